@@ -283,6 +283,7 @@ public final class ThreadJudge {
     private int size;
     private int fault;
     private int place = BAD;
+    private boolean degraded;
     private final Program program = new Program();
     private final Reader reader = new Reader(program);
     private final Linker linker = new Linker(program, reader);
@@ -349,7 +350,8 @@ public final class ThreadJudge {
         question.forget();
         fault = 0;
         place = BAD;
-        if (!reader.readAll(text, size)) {
+        reader.open();
+        if (!reader.read(reader.library, reader.library.length) || !reader.read(text, size)) {
             fault = reader.fault;
             place = reader.place;
         } else if (!linker.link(size)) {
@@ -389,7 +391,7 @@ public final class ThreadJudge {
             case 13: return monitors.knots;
             case 14: return monitors.waits;
             case 15: return flow.openCount();
-            default: return flow.degraded ? 1 : 0;
+            default: return degraded ? 1 : 0;
         }
     }
 
@@ -492,11 +494,11 @@ public final class ThreadJudge {
         }
         machine.live = false;
         flow.done = false;
-        flow.degraded = false;
-        if (!flow.solve(policy, granted)) {
+        degraded = !flow.solve(policy, granted);
+        if (degraded) {
             flow.solve(0, granted);
-            flow.degraded = true;
         }
+        degraded = degraded || flow.instances > granted;
         threads.conclude();
         monitors.conclude();
         flow.done = true;
@@ -634,7 +636,14 @@ public final class ThreadJudge {
         if (!machine.live || steps < 1 || steps > STEPS) {
             return BAD;
         }
-        return machine.drive(steps, draw);
+        int x = draw;
+        for (int k = 0; k < steps; k++) {
+            x = x * 1103515245 + 12345 & 0x7fffffff;
+            if (machine.go(machine.ready(x / 65536)) == 0) {
+                return k;
+            }
+        }
+        return steps;
     }
 
     public int state(int t, int what) {
@@ -872,7 +881,7 @@ public final class ThreadJudge {
             for (int d = c, n = 0; d >= 0 && n < CLASSES; d = cls[C_UP][d], n++) {
                 int from = cls[C_METHOD][d];
                 for (int m = from; m < from + cls[C_METHODS][d]; m++) {
-                    if (mth[M_NAME][m] == name && mth[M_PARAMS][m] == 0 && hasFlag(m, LINES)) {
+                    if (mth[M_NAME][m] == name && mth[M_PARAMS][m] == 0 && (mth[M_FLAGS][m] & LINES) != 0) {
                         return m;
                     }
                 }
@@ -897,7 +906,7 @@ public final class ThreadJudge {
 
         /** Whether a site makes lambdas for the abstract method of a sign. */
         boolean isLambdaFor(int site, int sign) {
-            return isLambda(site) && mth[M_SIGN][code[I_MADE][site]] == sign;
+            return site < size && code[I_OP][site] == LAMBDA && mth[M_SIGN][code[I_MADE][site]] == sign;
         }
 
         /** The method that 49, 50 call on what comes from a site. */
@@ -1015,6 +1024,7 @@ public final class ThreadJudge {
         private static final int OUTSIDE = 0;
         private static final int IN_CLASS = 1;
         private static final int IN_METHOD = 2;
+        private static final int IN_LINE = 3;
 
         private static final int NAMES = 6400;
         private static final int SIGNS = 16000;
@@ -1023,7 +1033,7 @@ public final class ThreadJudge {
 
         private final Program p;
         private final char[] known;
-        private final char[] library;
+        final char[] library;
         private final char[] signs = new char[SIGNS];
         private final int[] start = new int[NAMES];
         private final int[] length = new int[NAMES];
@@ -1053,7 +1063,8 @@ public final class ThreadJudge {
             source = library;
         }
 
-        boolean readAll(char[] text, int n) {
+        /** Forgets all names but those that are known ahead. */
+        void open() {
             fault = 0;
             place = BAD;
             names = 0;
@@ -1064,7 +1075,6 @@ public final class ThreadJudge {
                     from = k + 1;
                 }
             }
-            return read(library, library.length) && read(text, n);
         }
 
         // ---- names
@@ -1214,7 +1224,7 @@ public final class ThreadJudge {
                 v = Math.min(v * 10 + source[k] - '0', 1L << 40);
             }
             v = minus ? -v : v;
-            if (k == first || v < Integer.MIN_VALUE || v > Integer.MAX_VALUE) {
+            if (k == first || v < -2147483648L || v > 2147483647L) {
                 return wrong(pos);
             }
             token(NUMBER, pos, (int) v);
@@ -1223,7 +1233,7 @@ public final class ThreadJudge {
 
         // ---- grammar; what can't come is the token at which a function gives up
 
-        private boolean read(char[] from, int n) {
+        boolean read(char[] from, int n) {
             cut(from, n);
             at = 0;
             mode = OUTSIDE;
@@ -1231,7 +1241,7 @@ public final class ThreadJudge {
                 if (mode == OUTSIDE && kinds[at] == END) {
                     return true;
                 }
-                if (!(mode == OUTSIDE ? classHead() : mode == IN_CLASS ? member() : line())) {
+                if (!readOn()) {
                     break;
                 }
             }
@@ -1240,6 +1250,18 @@ public final class ThreadJudge {
                 place = places[at];
             }
             return false;
+        }
+
+        private boolean readOn() {
+            switch (mode) {
+                case OUTSIDE: return classHead();
+                case IN_CLASS: return member();
+                case IN_METHOD: return line();
+                default:
+                    mode = IN_METHOD;
+                    int i = p.size - 1;
+                    return wanted(i, FORMS.charAt(p.code[I_OP][i])) && takeSign(';');
+            }
         }
 
         private boolean tooMuch() {
@@ -1376,7 +1398,8 @@ public final class ThreadJudge {
         }
 
         private boolean isType() {
-            return isName() || isWord(W_INT) || isWord(W_VOID);
+            int v = values[at];
+            return kinds[at] == WORD && (v >= RESERVED || v == W_INT || v == W_VOID);
         }
 
         /** A type as it is told: twice its word, and 1 for an array; BAD if none comes. */
@@ -1534,7 +1557,8 @@ public final class ThreadJudge {
             p.code[I_NAMED][i] = BAD;
             p.code[I_MADE][i] = BAD;
             at++;
-            return wanted(i, FORMS.charAt(op)) && takeSign(';');
+            mode = IN_LINE;
+            return true;
         }
 
         private int makers() {
@@ -2547,24 +2571,30 @@ public final class ThreadJudge {
         // the parts of what is at hand while an instruction is looked at
         private static final int MADE = 0;
         private static final int THROWN = WORDS;
+        // something that nodes read is new; a node is to be looked at
+        private static final int MOVED = 1;
+        private static final int WOKEN = 2;
+        // columns of nodes
+        private static final int D_OWNER = 0;
+        private static final int D_NATIVES = 1;
+        private static final int D_DIRTY = 2;
 
         private final Program p;
         boolean done;
-        boolean degraded;
         private int policy;
         private int granted;
         private boolean full;
-        private boolean moved;
-        private boolean woken;
+        /** What is new in this turn: bits MOVED, WOKEN. */
+        private int news;
         int instances;
         final int[][] inst = new int[4][INSTANCES];
-        private final int[] firstOf = new int[METHODS];
+        /** The first instance of a method; behind that the first object of a site. */
+        private final int[] heads = new int[METHODS + SITES];
         /** A node is an instruction of an instance. */
         int nodes;
-        final int[] owner = new int[NODES];
+        final int[][] nodeTable = new int[3][NODES];
         int objects;
         final int[][] obj = new int[4][OBJECTS];
-        private final int[] siteHead = new int[SITES];
         final long[] sets = new long[NODES * PLACES * WORDS];
         /** Fields, elements, what lambdas have; the last row is of static fields. */
         final long[] slots = new long[(OBJECTS + 1) * FIELDS * WORDS];
@@ -2573,8 +2603,6 @@ public final class ThreadJudge {
         final long[] leads = new long[NODES * 2 * INSTANCE_WORDS];
         /** Classes that a node lets begin; last all that begin. */
         final long[] begun = new long[NODES + 1];
-        final int[] natives = new int[NODES];
-        private final int[] dirty = new int[NODES];
         private final int[] open = new int[CODE];
         /** Instances started for an object; last the objects. */
         final long[] started = new long[OBJECTS * INSTANCE_WORDS + WORDS];
@@ -2612,7 +2640,7 @@ public final class ThreadJudge {
         }
 
         int instructionOf(int node) {
-            int k = owner[node];
+            int k = nodeTable[D_OWNER][node];
             return p.mth[M_FIRST][inst[N_METHOD][k]] + node - inst[N_BASE][k];
         }
 
@@ -2629,39 +2657,38 @@ public final class ThreadJudge {
             forget();
             instanceAt(p.main, NONE);
             letBegin(BAD, p.mth[M_CLASS][p.main]);
-            woken = true;
-            for (int turn = 0; turn < FAR && (woken || moved) && !full; turn++) {
-                boolean again = moved;
-                moved = false;
-                woken = false;
-                for (int node = 0; node < nodes && !full; node++) {
-                    if (dirty[node] != 0 || again && reads(node)) {
-                        dirty[node] = 0;
-                        lookAt(node);
+            for (int turn = 0; turn < FAR && news != 0 && !full; turn++) {
+                boolean again = (news & MOVED) != 0;
+                news = 0;
+                for (int at = 0; at < nodes && !full; at++) {
+                    if (nodeTable[D_DIRTY][at] != 0 || again && reads(at)) {
+                        nodeTable[D_DIRTY][at] = 0;
+                        lookAt(at);
                     }
                 }
             }
-            degraded = policy == 0 && instances > granted;
             return !full;
         }
 
         private void forget() {
             Arrays.fill(sets, 0, nodes * PLACES * WORDS, 0L);
-            Arrays.fill(slots, 0L);
-            Arrays.fill(ends, 0L);
+            Arrays.fill(slots, 0, slot(objects, 0), 0L);
+            Arrays.fill(slots, slot(OBJECTS, 0), slot(OBJECTS + 1, 0), 0L);
+            Arrays.fill(ends, 0, gives(instances), 0L);
             Arrays.fill(leads, 0, nodes * 2 * INSTANCE_WORDS, 0L);
-            Arrays.fill(begun, 0L);
-            Arrays.fill(natives, 0);
-            Arrays.fill(dirty, 0);
+            Arrays.fill(begun, 0, nodes, 0L);
+            begun[NODES] = 0L;
+            Arrays.fill(nodeTable[D_NATIVES], 0, nodes, 0);
+            Arrays.fill(nodeTable[D_DIRTY], 0, nodes, 0);
             Arrays.fill(open, 0);
-            Arrays.fill(started, 0L);
-            Arrays.fill(firstOf, BAD);
-            Arrays.fill(siteHead, BAD);
+            Arrays.fill(started, 0, objects * INSTANCE_WORDS, 0L);
+            Arrays.fill(started, OBJECTS * INSTANCE_WORDS, OBJECTS * INSTANCE_WORDS + WORDS, 0L);
+            Arrays.fill(heads, BAD);
             instances = 0;
             nodes = 0;
             objects = 0;
             full = false;
-            moved = false;
+            news = WOKEN;
         }
 
         /** Whether a node depends on more than what comes to it. */
@@ -2670,13 +2697,30 @@ public final class ThreadJudge {
             return op >= GET && op <= ELEMENT || op >= VIRTUAL && op <= CALL;
         }
 
+        /** Adds a set of objects to another one: whether that grew. */
+        private boolean join(long[] to, int a, long[] more, int b) {
+            return merge(to, a, more, b, objects + 63 >> 6);
+        }
+
+        private boolean joinLocals(int to, int node) {
+            boolean grew = false;
+            for (int q = 0; q < LOCALS; q++) {
+                grew |= join(sets, at(to, q), sets, at(node, q));
+            }
+            return grew;
+        }
+
+        private void moved(boolean grew) {
+            news |= grew ? MOVED : 0;
+        }
+
         private void wake(int node) {
-            dirty[node] = 1;
-            woken = true;
+            nodeTable[D_DIRTY][node] = 1;
+            news |= WOKEN;
         }
 
         int findInstance(int m, int context) {
-            int k = m < 0 ? BAD : firstOf[m];
+            int k = m < 0 ? BAD : heads[m];
             for (int n = 0; k >= 0 && n < INSTANCES; n++) {
                 if (inst[N_CONTEXT][k] == context) {
                     return k;
@@ -2687,7 +2731,7 @@ public final class ThreadJudge {
         }
 
         int nextInstance(int m, int k) {
-            return k < 0 ? firstOf[m] : inst[N_NEXT][k];
+            return k < 0 ? heads[m] : inst[N_NEXT][k];
         }
 
         private int instanceAt(int m, int context) {
@@ -2704,19 +2748,19 @@ public final class ThreadJudge {
             inst[N_METHOD][k] = m;
             inst[N_CONTEXT][k] = context;
             inst[N_BASE][k] = nodes;
-            inst[N_NEXT][k] = firstOf[m];
-            firstOf[m] = k;
+            inst[N_NEXT][k] = heads[m];
+            heads[m] = k;
             for (int j = 0; j < n; j++) {
-                owner[nodes + j] = k;
-                dirty[nodes + j] = 1;
+                nodeTable[D_OWNER][nodes + j] = k;
+                nodeTable[D_DIRTY][nodes + j] = 1;
             }
             nodes += n;
-            woken = true;
+            news |= WOKEN;
             return k;
         }
 
         int findObject(int site, int context) {
-            int o = siteHead[site];
+            int o = heads[METHODS + site];
             for (int n = 0; o >= 0 && n < OBJECTS; n++) {
                 if (obj[O_CONTEXT][o] == context) {
                     return o;
@@ -2738,9 +2782,9 @@ public final class ThreadJudge {
             o = objects++;
             obj[O_SITE][o] = site;
             obj[O_CONTEXT][o] = context;
-            obj[O_NEXT][o] = siteHead[site];
+            obj[O_NEXT][o] = heads[METHODS + site];
             obj[O_TYPE][o] = p.typeOf(site);
-            siteHead[site] = o;
+            heads[METHODS + site] = o;
             return o;
         }
 
@@ -2781,7 +2825,7 @@ public final class ThreadJudge {
         }
 
         private void put(int to, long[] row, int at) {
-            moved |= merge(slots, to, row, at, WORDS);
+            moved(join(slots, to, row, at));
         }
 
         /** A class begins, by a node or (BAD) by none, and what it extends. */
@@ -2797,7 +2841,7 @@ public final class ThreadJudge {
                 } else if (m >= 0) {
                     int k = instanceAt(m, NONE);
                     if (k >= 0) {
-                        merge(now, THROWN, ends, letsGo(k), WORDS);
+                        join(now, THROWN, ends, letsGo(k));
                     }
                 }
             }
@@ -2812,7 +2856,7 @@ public final class ThreadJudge {
         // ---- one instruction of one instance
 
         private void lookAt(int node) {
-            int k = owner[node];
+            int k = nodeTable[D_OWNER][node];
             int i = instructionOf(node);
             int m = inst[N_METHOD][k];
             if (p.code[I_HEIGHT][i] < 0) {
@@ -2839,7 +2883,7 @@ public final class ThreadJudge {
         }
 
         private void useStack(int node, int i, int op, int base) {
-            int context = contextIn(inst[N_CONTEXT][owner[node]]);
+            int context = contextIn(inst[N_CONTEXT][nodeTable[D_OWNER][node]]);
             switch (op) {
                 case TEXT_OF:
                     make(STRING_SITES + p.code[I_TARGET][i], NONE);
@@ -2868,10 +2912,10 @@ public final class ThreadJudge {
                     break;
                 case THROW:
                     peril(1 << NULL_POINTER);
-                    merge(now, THROWN, sets, at(node, base), WORDS);
+                    join(now, THROWN, sets, at(node, base));
                     break;
                 case GIVE:
-                    moved |= merge(ends, gives(owner[node]), sets, at(node, base), WORDS);
+                    moved(join(ends, gives(nodeTable[D_OWNER][node]), sets, at(node, base)));
                     break;
                 default:
                     break;
@@ -2888,11 +2932,11 @@ public final class ThreadJudge {
 
         private void useHeap(int node, int i, int op, int base) {
             int target = p.code[I_TARGET][i];
-            int context = contextIn(inst[N_CONTEXT][owner[node]]);
+            int context = contextIn(inst[N_CONTEXT][nodeTable[D_OWNER][node]]);
             switch (op) {
                 case GET_STATIC:
                     letBegin(node, p.fld[F_CLASS][target]);
-                    merge(now, MADE, slots, slot(OBJECTS, target), WORDS);
+                    join(now, MADE, slots, slot(OBJECTS, target));
                     break;
                 case PUT_STATIC:
                     letBegin(node, p.fld[F_CLASS][target]);
@@ -2926,7 +2970,7 @@ public final class ThreadJudge {
                     continue;
                 }
                 if (op == GET) {
-                    merge(now, MADE, slots, slot(o, f), WORDS);
+                    join(now, MADE, slots, slot(o, f));
                 } else {
                     put(slot(o, f), sets, at(node, base + 1));
                 }
@@ -2941,12 +2985,12 @@ public final class ThreadJudge {
                     continue;
                 }
                 if (op == ELEMENT) {
-                    merge(now, MADE, slots, slot(o, 0), WORDS);
+                    join(now, MADE, slots, slot(o, 0));
                     continue;
                 }
                 int value = at(node, base + 2);
                 for (int v = nextBit(sets, value, 0, objects); v < objects; v = nextBit(sets, value, v + 1, objects)) {
-                    moved |= p.fits(obj[O_TYPE][v], type) && addBit(slots, slot(o, 0), v);
+                    moved(p.fits(obj[O_TYPE][v], type) && addBit(slots, slot(o, 0), v));
                 }
             }
         }
@@ -2963,7 +3007,7 @@ public final class ThreadJudge {
                 if (m < 0) {
                     peril(1 << NO_METHOD);
                 } else if (p.hasFlag(m, NATIVE)) {
-                    natives[node] |= 1 << m;
+                    nodeTable[D_NATIVES][node] |= 1 << m;
                     peril(perilOf(m));
                     if (m == NEW_INSTANCE) {
                         makeInstance(node, o);
@@ -2989,7 +3033,7 @@ public final class ThreadJudge {
                 callOne(node, m, BAD, BAD, base);
                 return;
             }
-            natives[node] |= 1 << m;
+            nodeTable[D_NATIVES][node] |= 1 << m;
             peril(perilOf(m));
             int at = at(node, base);
             for (int o = nextBit(sets, at, 0, objects); m != PRINT && o < objects; o = nextBit(sets, at, o + 1, objects)) {
@@ -3025,7 +3069,7 @@ public final class ThreadJudge {
                 return;
             }
             letBegin(node, c);
-            int context = contextIn(inst[N_CONTEXT][owner[node]]);
+            int context = contextIn(inst[N_CONTEXT][nodeTable[D_OWNER][node]]);
             make(INSTANCE_SITES + c, context);
             int made = findObject(INSTANCE_SITES + c, context);
             if (made >= 0) {
@@ -3078,7 +3122,7 @@ public final class ThreadJudge {
                 return;
             }
             int site = receiver < 0 ? BAD : obj[O_SITE][receiver];
-            int k = instanceAt(m, contextFor(instructionOf(node), site, inst[N_CONTEXT][owner[node]]));
+            int k = instanceAt(m, contextFor(instructionOf(node), site, inst[N_CONTEXT][nodeTable[D_OWNER][node]]));
             if (k < 0) {
                 return;
             }
@@ -3091,16 +3135,16 @@ public final class ThreadJudge {
             }
             int has = lambda < 0 ? 0 : p.takes(obj[O_SITE][lambda]);
             for (int j = 0; j < has; j++) {
-                grew |= merge(sets, at(to, q++), slots, slot(lambda, j), WORDS);
+                grew |= join(sets, at(to, q++), slots, slot(lambda, j));
             }
             for (int j = 0; j < p.mth[M_PARAMS][m] - has; j++) {
-                grew |= merge(sets, at(to, q++), sets, at(node, place + j), WORDS);
+                grew |= join(sets, at(to, q++), sets, at(node, place + j));
             }
             if (grew) {
                 wake(to);
             }
-            merge(now, MADE, ends, gives(k), WORDS);
-            merge(now, THROWN, ends, letsGo(k), WORDS);
+            join(now, MADE, ends, gives(k));
+            join(now, THROWN, ends, letsGo(k));
         }
 
         private void start(int node, int o) {
@@ -3109,7 +3153,7 @@ public final class ThreadJudge {
             int last = startOne(node, o, p.select(obj[O_TYPE][o], p.mth[M_SIGN][UNCAUGHT]));
             if (run >= 0 && last >= 0) {
                 int to = inst[N_BASE][last];
-                if (merge(sets, at(to, 1), ends, letsGo(run), WORDS)) {
+                if (join(sets, at(to, 1), ends, letsGo(run))) {
                     wake(to);
                 }
             }
@@ -3148,7 +3192,7 @@ public final class ThreadJudge {
             int c = p.mth[M_CATCH][m];
             for (int k = c; k < c + p.mth[M_CATCHES][m]; k++) {
                 int to = node + p.trap[T_HANDLER][k] - i;
-                if (p.within(k, i) && merge(sets, at(to, 0), sets, at(node, 0), LOCALS * WORDS)) {
+                if (p.within(k, i) && joinLocals(to, node)) {
                     wake(to);
                 }
             }
@@ -3159,9 +3203,9 @@ public final class ThreadJudge {
             boolean grew = false;
             for (int q = 0; q < places; q++) {
                 if (from[q] < 0) {
-                    grew |= merge(sets, at(to, q), now, MADE, WORDS);
+                    grew |= join(sets, at(to, q), now, MADE);
                 } else {
-                    grew |= merge(sets, at(to, q), sets, at(node, from[q]), WORDS);
+                    grew |= join(sets, at(to, q), sets, at(node, from[q]));
                 }
             }
             if (grew) {
@@ -3173,7 +3217,7 @@ public final class ThreadJudge {
             for (int o = nextBit(now, THROWN, 0, objects); o < objects; o = nextBit(now, THROWN, o + 1, objects)) {
                 int c = p.catchFor(i, obj[O_TYPE][o]);
                 if (c < 0) {
-                    moved |= addBit(ends, letsGo(k), o);
+                    moved(addBit(ends, letsGo(k), o));
                 } else {
                     int to = node + p.trap[T_HANDLER][c] - i;
                     if (addBit(sets, at(to, LOCALS), o)) {
@@ -3205,7 +3249,7 @@ public final class ThreadJudge {
 
         int instancesOf(int m) {
             int n = 0;
-            for (int k = firstOf[m]; k >= 0 && n < INSTANCES; k = inst[N_NEXT][k]) {
+            for (int k = heads[m]; k >= 0 && n < INSTANCES; k = inst[N_NEXT][k]) {
                 n++;
             }
             return n;
@@ -3219,9 +3263,9 @@ public final class ThreadJudge {
         long[] allIn(int i, int place) {
             Arrays.fill(now, 0L);
             int m = p.code[I_METHOD][i];
-            int k = firstOf[m];
+            int k = heads[m];
             for (int n = 0; k >= 0 && n < INSTANCES; n++) {
-                merge(now, 0, sets, at(nodeOf(k, i), place), WORDS);
+                join(now, 0, sets, at(nodeOf(k, i), place));
                 k = inst[N_NEXT][k];
             }
             return now;
@@ -3240,7 +3284,7 @@ public final class ThreadJudge {
                 at = slot(o, -2 - f);
             }
             if (at >= 0) {
-                merge(now, 0, slots, at, WORDS);
+                join(now, 0, slots, at);
             }
             return now;
         }
@@ -3524,9 +3568,9 @@ public final class ThreadJudge {
         }
 
         private void fillReach() {
-            Arrays.fill(reach, 0L);
+            Arrays.fill(reach, 0, flow.instances * INSTANCE_WORDS, 0L);
             for (int node = 0; node < flow.nodes; node++) {
-                addNext(node, reach, flow.owner[node] * INSTANCE_WORDS);
+                addNext(node, reach, flow.nodeTable[Flow.D_OWNER][node] * INSTANCE_WORDS);
             }
             for (int k = 0; k < flow.instances; k++) {
                 for (int j = 0; j < flow.instances; j++) {
@@ -3560,7 +3604,7 @@ public final class ThreadJudge {
         }
 
         private void fillRuns() {
-            Arrays.fill(runBy, 0L);
+            Arrays.fill(runBy, 0, flow.instances * WORDS, 0L);
             for (int t = 0; t < threads; t++) {
                 Arrays.fill(now, 0L);
                 if (t == 0) {
@@ -3603,7 +3647,7 @@ public final class ThreadJudge {
         }
 
         private void fillTops() {
-            Arrays.fill(tops, 0L);
+            Arrays.fill(tops, 0, flow.instances * 3, 0L);
             int main = mainInstance();
             for (int offset = 0; offset < mainCount(); offset++) {
                 Arrays.fill(now, 0L);
@@ -3629,7 +3673,7 @@ public final class ThreadJudge {
         private boolean starts(int node, int o) {
             int i = flow.instructionOf(node);
             int place = LOCALS + p.code[I_HEIGHT][i] - p.takes(i);
-            int natives = flow.natives[node];
+            int natives = flow.nodeTable[Flow.D_NATIVES][node];
             if ((natives >> HOOK & 1) != 0) {
                 return flow.holdsObject(node, place, o);
             }
@@ -3639,13 +3683,13 @@ public final class ThreadJudge {
         }
 
         private void fillStarters() {
-            Arrays.fill(starters, 0L);
+            Arrays.fill(starters, 0, threads * 3, 0L);
             int main = mainInstance();
             for (int node = 0; node < flow.nodes; node++) {
-                if ((flow.natives[node] & (1 << START | 1 << HOOK)) == 0) {
+                if ((flow.nodeTable[Flow.D_NATIVES][node] & (1 << START | 1 << HOOK)) == 0) {
                     continue;
                 }
-                boolean here = flow.owner[node] == main;
+                boolean here = flow.nodeTable[Flow.D_OWNER][node] == main;
                 int offset = here ? node - flow.inst[Flow.N_BASE][main] : 128;
                 for (int t = 1; t < threads; t++) {
                     if (starts(node, objectOf[t])) {
@@ -3729,7 +3773,7 @@ public final class ThreadJudge {
         private boolean joins(int offset, int o) {
             int i = mainFirst() + offset;
             int node = flow.nodeOf(mainInstance(), i);
-            if ((flow.natives[node] >> JOIN & 1) == 0) {
+            if ((flow.nodeTable[Flow.D_NATIVES][node] >> JOIN & 1) == 0) {
                 return false;
             }
             int from = p.mth[M_CATCH][p.main];
@@ -3743,7 +3787,7 @@ public final class ThreadJudge {
         }
 
         private void fillLoose() {
-            Arrays.fill(loose, 0L);
+            Arrays.fill(loose, 0, (flow.instances + mainCount()) * WORDS, 0L);
             int main = mainInstance();
             for (int t = 1; t < threads; t++) {
                 fillBefore(t);
@@ -3786,8 +3830,8 @@ public final class ThreadJudge {
         }
 
         boolean areParallel(int a, int b) {
-            int k = flow.owner[a];
-            int l = flow.owner[b];
+            int k = flow.nodeTable[Flow.D_OWNER][a];
+            int l = flow.nodeTable[Flow.D_OWNER][b];
             return areOthers(k, l) || meetsMain(a, k, l) || meetsMain(b, l, k);
         }
 
@@ -4011,12 +4055,12 @@ public final class ThreadJudge {
                 addSingle(sure, node * WORDS, flow.sets, rowAt(node, i, r));
             }
             Arrays.fill(now, 0L);
-            addLock(flow.owner[node], now, 0);
+            addLock(flow.nodeTable[Flow.D_OWNER][node], now, 0);
             addSingle(sure, node * WORDS, now, 0);
         }
 
         private void fillSure() {
-            Arrays.fill(sure, 0L);
+            Arrays.fill(sure, 0, flow.nodes * WORDS, 0L);
             for (int node = 0; node < flow.nodes; node++) {
                 fillOwnSure(node);
             }
@@ -4027,7 +4071,7 @@ public final class ThreadJudge {
             for (int turn = 0; turn < FAR && more; turn++) {
                 more = false;
                 for (int node = 0; node < flow.nodes; node++) {
-                    int from = surely(flow.owner[node]);
+                    int from = surely(flow.nodeTable[Flow.D_OWNER][node]);
                     for (int k = 0; k < flow.instances; k++) {
                         if (hasBit(flow.leads, Flow.callsAt(node), k)) {
                             more |= narrow(surely(k), from, node * WORDS);
@@ -4036,7 +4080,7 @@ public final class ThreadJudge {
                 }
             }
             for (int node = 0; node < flow.nodes; node++) {
-                merge(sure, node * WORDS, entry, surely(flow.owner[node]), WORDS);
+                merge(sure, node * WORDS, entry, surely(flow.nodeTable[Flow.D_OWNER][node]), WORDS);
             }
         }
 
@@ -4052,7 +4096,7 @@ public final class ThreadJudge {
         }
 
         private void fillMay() {
-            Arrays.fill(may, 0L);
+            Arrays.fill(may, 0, flow.nodes * WORDS, 0L);
             for (int node = 0; node < flow.nodes; node++) {
                 int i = flow.instructionOf(node);
                 for (int r = 0; p.code[I_HEIGHT][i] >= 0 && r < p.code[I_ROW][i]; r++) {
@@ -4067,7 +4111,7 @@ public final class ThreadJudge {
             for (int turn = 0; turn < FAR && more; turn++) {
                 more = false;
                 for (int node = 0; node < flow.nodes; node++) {
-                    merge(may, node * WORDS, entry, maybe(flow.owner[node]), WORDS);
+                    merge(may, node * WORDS, entry, maybe(flow.nodeTable[Flow.D_OWNER][node]), WORDS);
                     more |= handOn(node);
                 }
             }
@@ -4165,7 +4209,8 @@ public final class ThreadJudge {
         }
 
         boolean isRace(int i, int j) {
-            return hasBit(raced, Math.min(i, j) * CODE_WORDS, Math.max(i, j));
+            int high = Math.max(i, j);
+            return (raced[Math.min(i, j) * CODE_WORDS + (high >> 6)] >>> (high & 63) & 1L) != 0;
         }
 
         boolean isRacing(int m) {
@@ -4201,7 +4246,7 @@ public final class ThreadJudge {
         // ---- knots
 
         private void fillWanted() {
-            Arrays.fill(wanted, 0L);
+            Arrays.fill(wanted, 0, flow.nodes * WORDS, 0L);
             for (int node = 0; node < flow.nodes; node++) {
                 int i = flow.instructionOf(node);
                 if (p.code[I_HEIGHT][i] < 0) {
@@ -4215,7 +4260,7 @@ public final class ThreadJudge {
                         addLock(k, wanted, node * WORDS);
                     }
                 }
-                for (int o = 0; (flow.natives[node] >> WAIT & 1) != 0 && o < flow.objects; o++) {
+                for (int o = 0; (flow.nodeTable[Flow.D_NATIVES][node] >> WAIT & 1) != 0 && o < flow.objects; o++) {
                     if (waitsFor(node, i, o)) {
                         addBit(wanted, node * WORDS, o);
                     }
@@ -4231,7 +4276,7 @@ public final class ThreadJudge {
         }
 
         private void fillChains() {
-            Arrays.fill(chains, 0L);
+            Arrays.fill(chains, 0, flow.objects * WORDS, 0L);
             for (int node = 0; node < flow.nodes; node++) {
                 for (int o = 0; meet(wanted, node * WORDS, wanted, node * WORDS, WORDS) && o < flow.objects; o++) {
                     if (hasBit(may, node * WORDS, o)) {
@@ -4325,7 +4370,7 @@ public final class ThreadJudge {
             waits = 0;
             for (int node = 0; node < flow.nodes; node++) {
                 int i = flow.instructionOf(node);
-                if ((flow.natives[node] >> WAIT & 1) != 0) {
+                if ((flow.nodeTable[Flow.D_NATIVES][node] >> WAIT & 1) != 0) {
                     int at = receiverAt(node);
                     boolean one = bitCount(flow.sets, at, WORDS) == 1 && meet(flow.sets, at, t.singular, 0, WORDS)
                         && meet(flow.sets, at, sure, node * WORDS, WORDS);
@@ -4782,22 +4827,18 @@ public final class ThreadJudge {
             flow = solved;
         }
 
-        void clean() {
+        /** Forgets a run that had so many things. */
+        void clean(int things) {
             Arrays.fill(now, 0);
             Arrays.fill(met, 0L);
             Arrays.fill(begun, 0);
-            cleanThing(THINGS);
+            Arrays.fill(left, 0, things * THREADS, 0);
+            Arrays.fill(seen, 0, things * FIELDS * PLACE_MARKS, 0);
+            Arrays.fill(seen, THINGS * FIELDS * PLACE_MARKS, (THINGS + 1) * FIELDS * PLACE_MARKS, 0);
             kept = 0;
             total = 0;
             good = true;
             now[0] = 1;
-        }
-
-        void cleanThing(int n) {
-            Arrays.fill(seen, n * FIELDS * PLACE_MARKS, (n + 1) * FIELDS * PLACE_MARKS, 0);
-            if (n < THINGS) {
-                Arrays.fill(left, n * THREADS, (n + 1) * THREADS, 0);
-            }
         }
 
         private void join(int[] to, int a, int[] from, int b) {
@@ -4973,8 +5014,8 @@ public final class ThreadJudge {
         }
 
         void open() {
+            clocks.clean(heap.things);
             heap.clean();
-            clocks.clean();
             live = true;
             good = true;
             over = false;
@@ -5292,7 +5333,7 @@ public final class ThreadJudge {
                 became = perform(t, f, i);
             }
             if (became == RAISES) {
-                plan[P_WHAT] = makeThing(MACHINE_SITES + plan[P_RAISE], NONE);
+                plan[P_WHAT] = heap.make(MACHINE_SITES + plan[P_RAISE], NONE);
                 became = plan[P_WHAT] < 0 ? FULL : THROWS;
             }
             if (became == FULL) {
@@ -5324,27 +5365,6 @@ public final class ThreadJudge {
             }
         }
 
-        private int makeThing(int site, int context) {
-            int n = heap.make(site, context);
-            if (n >= 0) {
-                clocks.cleanThing(n);
-            }
-            return n;
-        }
-
-        /** The thing of a STRING, CLASS or METHOD, which comes to be if it is not there. */
-        private int singleThing(int site) {
-            int n = heap.known(site);
-            if (n >= 0) {
-                return n;
-            }
-            n = heap.knownOrMade(site);
-            if (n >= 0) {
-                clocks.cleanThing(n);
-            }
-            return n;
-        }
-
         private int wakeUp(int t, int f, int i) {
             int n = thread[T_AT][t];
             take(t, n);
@@ -5356,7 +5376,7 @@ public final class ThreadJudge {
         /** The first step of a frame of run, uncaught or MAIN that is 'synchronized'. */
         private int enterLock(int t, int f, int receiver) {
             int m = frame[R_METHOD][f];
-            int n = p.hasFlag(m, STATIC) ? singleThing(CLASS_SITES + p.mth[M_CLASS][m]) : receiver;
+            int n = p.hasFlag(m, STATIC) ? heap.knownOrMade(CLASS_SITES + p.mth[M_CLASS][m]) : receiver;
             if (n < 0) {
                 return FULL;
             }
@@ -5408,7 +5428,7 @@ public final class ThreadJudge {
             switch (op) {
                 case PUSH: return finish(f, i, a & 0xffffffffL);
                 case TEXT_OF:
-                    int n = singleThing(STRING_SITES + p.code[I_TARGET][i]);
+                    int n = heap.knownOrMade(STRING_SITES + p.code[I_TARGET][i]);
                     return n < 0 ? FULL : finish(f, i, Heap.reference(n));
                 case NULL: return finish(f, i, Heap.NO_THING);
                 case LOAD: return finish(f, i, valueAt(f, a));
@@ -5563,7 +5583,7 @@ public final class ThreadJudge {
             if (became != ON) {
                 return became;
             }
-            int n = makeThing(i, contextIn(f));
+            int n = heap.make(i, contextIn(f));
             return n < 0 ? FULL : finish(f, i, Heap.reference(n));
         }
 
@@ -5572,7 +5592,7 @@ public final class ThreadJudge {
             if (length < 0 || length > ELEMENTS) {
                 return raise(SIZE);
             }
-            int n = makeThing(i, contextIn(f));
+            int n = heap.make(i, contextIn(f));
             if (n < 0) {
                 return FULL;
             }
@@ -5582,7 +5602,7 @@ public final class ThreadJudge {
 
         private int makeLambda(int f, int i) {
             int base = baseOf(f, i);
-            int n = makeThing(i, contextIn(f));
+            int n = heap.make(i, contextIn(f));
             if (n < 0) {
                 return FULL;
             }
@@ -5707,7 +5727,19 @@ public final class ThreadJudge {
             if (plan[P_METHOD] >= 0) {
                 return enter(t, f, i);
             }
-            return callNative(t, f, i);
+            if (plan[P_NATIVE] == WAIT) {
+                fallAsleep(t, plan[P_RECEIVER]);
+                return DONE;
+            }
+            if (plan[P_NATIVE] != START) {
+                return callNative(t, f, i);
+            }
+            if (threads >= THREADS) {
+                return FULL;
+            }
+            clocks.fork(t, threads);
+            startThread(plan[P_RECEIVER], i, nodeOf(f, i));
+            return finish(f, i, 0L);
         }
 
         /** A frame comes for the method that the call came to. */
@@ -5722,7 +5754,7 @@ public final class ThreadJudge {
                 return FULL;
             }
             if (made) {
-                receiver = makeThing(plan[P_WHAT], contextIn(f));
+                receiver = heap.make(plan[P_WHAT], contextIn(f));
             }
             boolean fixed = p.hasFlag(m, STATIC);
             int site = fixed ? BAD : heap.thing[Heap.H_SITE][receiver];
@@ -5742,7 +5774,10 @@ public final class ThreadJudge {
             frame[R_NATIVE][g] = plan[P_NATIVE];
             frame[R_THING][g] = made ? receiver : BAD;
             if (locks) {
-                enterLock(t, g, receiver);
+                int n = fixed ? heap.knownOrMade(CLASS_SITES + p.mth[M_CLASS][m]) : receiver;
+                take(t, n);
+                frame[R_LOCK][g] = n;
+                frame[R_LOCKS][g] = 0;
             }
             return DONE;
         }
@@ -5755,24 +5790,14 @@ public final class ThreadJudge {
             int n = plan[P_RECEIVER];
             int v = (int) valueAt(f, plan[P_VALUES]);
             switch (plan[P_NATIVE]) {
-                case WAIT:
-                    fallAsleep(t, n);
-                    return DONE;
                 case NOTIFY:
                 case NOTIFY_ALL:
                     tell(n, plan[P_NATIVE] == NOTIFY);
                     break;
                 case NAMED:
                 case FIND:
-                    int told = singleThing(plan[P_WHAT]);
+                    int told = heap.knownOrMade(plan[P_WHAT]);
                     return told < 0 ? FULL : finish(f, i, Heap.reference(told));
-                case START:
-                    if (threads >= THREADS) {
-                        return FULL;
-                    }
-                    clocks.fork(t, threads);
-                    startThread(n, i, nodeOf(f, i));
-                    break;
                 case JOIN:
                     if (heap.thing[Heap.H_THREAD][n] >= 0) {
                         clocks.behind(t, heap.thing[Heap.H_THREAD][n]);
@@ -6020,29 +6045,22 @@ public final class ThreadJudge {
 
         // ---- what is told
 
-        int drive(int most, int draw) {
-            int x = draw;
-            for (int k = 0; k < most; k++) {
-                int ready = 0;
-                for (int t = 0; t < threads; t++) {
-                    ready += waitOf(t) == GOES ? 1 : 0;
-                }
-                if (over || ready == 0) {
-                    return k;
-                }
-                x = x * 1103515245 + 12345 & 0x7fffffff;
-                int left = x / 65536 % ready;
-                int t = 0;
-                for (; t < threads - 1; t++) {
-                    if (waitOf(t) == GOES && left-- == 0) {
-                        break;
-                    }
-                }
-                if (go(t) == 0) {
-                    return k;
+        /** The thread that is that far, modulo how many there are, among those that can go on; BAD: none can. */
+        int ready(int far) {
+            int n = 0;
+            for (int t = 0; t < threads; t++) {
+                n += waitOf(t) == GOES ? 1 : 0;
+            }
+            if (over || n == 0) {
+                return BAD;
+            }
+            int left = far % n;
+            for (int t = 0; t < threads; t++) {
+                if (waitOf(t) == GOES && left-- == 0) {
+                    return t;
                 }
             }
-            return most;
+            return BAD;
         }
 
         int total(int what) {
