@@ -92,7 +92,14 @@ final class Maker {
         for (int k = pick(4); k > 0; k--) {
             text.append(thread()).append(" dup; putstatic Main.t; virtual void Thread.start(); ");
         }
-        text.append(lines(true, 8, "return;")).append("} } ");
+        boolean kept = pick(3) == 0;
+        String last = "return;";
+        if (kept) {
+            text.append(of("new T0;", "new T1;", "new Thread; dup; lambda Runnable void " + cls() + ".s(); special void Thread.<init>(Runnable);")).append(" store 1; ");
+            text.append(pick(3) == 0 ? "getstatic Main.n; pop; " : "call void " + cls() + ".s(); ").append("load 1; virtual void Thread.start(); ");
+            last = of("", "getstatic Main.n; ifeq Z;") + " load 1; virtual void Thread.join(); " + of("getstatic Main.n; pop;", "call void " + cls() + ".s();", "push 1; putstatic Main.n;") + " Z: return;";
+        }
+        text.append(lines(true, kept ? 3 : 8, last)).append("} } ");
         return text.toString();
     }
 
