@@ -5326,7 +5326,7 @@ public final class ThreadJudge {
             int i = frame[R_CODE][f];
             int became;
             if (thread[T_MODE][t] == TOLD) {
-                became = wakeUp(t, f, i);
+                became = wakeUp(t);
             } else if (frame[R_LOCKS][f] != 0) {
                 became = enterLock(t, f, (int) valueAt(f, 0));
             } else {
@@ -5365,12 +5365,13 @@ public final class ThreadJudge {
             }
         }
 
-        private int wakeUp(int t, int f, int i) {
+        /** A thread that slept has its monitor as before; its wait is behind it already. */
+        private int wakeUp(int t) {
             int n = thread[T_AT][t];
             take(t, n);
             heap.thing[Heap.H_ENTERED][n] = thread[T_COUNT][t];
             thread[T_MODE][t] = GOES;
-            return finish(f, i, 0L);
+            return DONE;
         }
 
         /** The first step of a frame of run, uncaught or MAIN that is 'synchronized'. */
@@ -5729,7 +5730,7 @@ public final class ThreadJudge {
             }
             if (plan[P_NATIVE] == WAIT) {
                 fallAsleep(t, plan[P_RECEIVER]);
-                return DONE;
+                return finish(f, i, 0L);
             }
             if (plan[P_NATIVE] != START) {
                 return callNative(t, f, i);
@@ -6034,13 +6035,18 @@ public final class ThreadJudge {
                 if (flow.done) {
                     int held = objectOf(thread[T_WANT][v]);
                     int wanted = objectOf(thread[T_WANT][next]);
-                    good = good && monitors.isKnot(frame[R_CODE][top(next)], held, wanted);
+                    good = good && monitors.isKnot(wantingCode(next), held, wanted);
                 }
                 v = next;
                 if (v == u) {
                     return;
                 }
             }
+        }
+
+        /** The instruction by which a thread wants a monitor: of one that was told the wait behind which it stands. */
+        private int wantingCode(int t) {
+            return frame[R_CODE][top(t)] - (thread[T_MODE][t] == TOLD ? 1 : 0);
         }
 
         // ---- what is told

@@ -313,6 +313,8 @@ public final class MachineTest {
             }
             Judged.due("sleeps", x.state(t, 0), 2);
             Judged.due("sleeps at", x.state(t, 4), 0);
+            Judged.due("the wait is done", x.state(t, 2), 14 + 8);
+            Judged.due("its stack is empty", x.local(t, 10), -1);
             Judged.due("let go wholly", x.thing(0, 3), 0);
             Judged.due("does nothing", x.step(t), 0);
         }
