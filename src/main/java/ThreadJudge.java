@@ -692,18 +692,26 @@ public final class ThreadJudge {
     // ---- sets of bits in rows of long numbers
 
     private static boolean hasBit(long[] row, int at, int k) {
-        return (row[at + (k >> 6)] >>> (k & 63) & 1L) != 0;
+        int w = at + (k >> 6);
+        return w >= 0 && w < row.length && (row[w] >>> (k & 63) & 1L) != 0;
     }
 
     /** Whether it was new. */
     private static boolean addBit(long[] row, int at, int k) {
-        long was = row[at + (k >> 6)];
-        row[at + (k >> 6)] = was | 1L << (k & 63);
-        return row[at + (k >> 6)] != was;
+        int w = at + (k >> 6);
+        if (w < 0 || w >= row.length) {
+            return false;
+        }
+        long was = row[w];
+        row[w] = was | 1L << (k & 63);
+        return row[w] != was;
     }
 
     private static void dropBit(long[] row, int at, int k) {
-        row[at + (k >> 6)] &= ~(1L << (k & 63));
+        int w = at + (k >> 6);
+        if (w >= 0 && w < row.length) {
+            row[w] &= ~(1L << (k & 63));
+        }
     }
 
     /** The least member that is k or more; the bound, if none is below it. */
@@ -6008,6 +6016,9 @@ public final class ThreadJudge {
         // ---- deadlocks
 
         private void findRings() {
+            if (threads < 2) {
+                return;
+            }
             int blocked = 0;
             for (int u = 0; u < threads; u++) {
                 boolean waits = waitOf(u) == BLOCKED;
