@@ -530,6 +530,33 @@ public final class MachineTest {
         Judged.due("foreseen", x.foreseen() ? 1 : 0, 1);
         Judged.due("it stays one", x.step(0), 0);
         Judged.due("it stays one", x.count(22), 1);
+        deadlockBehindWait();
+    }
+
+    /** One that was told wants its monitor back, which another one has that wants what it holds. */
+    private static void deadlockBehindWait() {
+        ThreadJudge x = Judged.loaded("class T extends Thread { method void run() { getstatic Main.a; enter; getstatic Main.b; enter; getstatic Main.b; virtual void Object.wait(); getstatic Main.b; exit; getstatic Main.a; exit; return; } } "
+            + "class Main { static field Object a; static field Object b; static method void main() { new Object; putstatic Main.a; new Object; putstatic Main.b; new T; virtual void Thread.start(); "
+            + "getstatic Main.b; enter; getstatic Main.b; virtual void Object.notify(); getstatic Main.a; enter; getstatic Main.a; exit; getstatic Main.b; exit; return; } }");
+        for (int policy = 0; policy < 4; policy++) {
+            x.analyse(policy, 300);
+            x.begin();
+            for (int k = 0; k < 6; k++) {
+                x.step(0);
+            }
+            for (int k = 0; k < 6; k++) {
+                x.step(1);
+            }
+            Judged.due("sleeps", x.state(1, 0), 2);
+            for (int k = 0; k < 4; k++) {
+                x.step(0);
+            }
+            Judged.due("told", x.state(1, 0), 1);
+            Judged.due("not yet", x.count(22), 0);
+            x.step(0);
+            Judged.due("a ring", x.count(22), 1);
+            Judged.due("foreseen", x.foreseen() ? 1 : 0, 1);
+        }
     }
 
     private static void draws() {
