@@ -2619,6 +2619,7 @@ public final class ThreadJudge {
 
         Flow(Program program) {
             p = program;
+            Arrays.fill(heads, BAD);
         }
 
         // ---- places in the rows
@@ -2691,7 +2692,12 @@ public final class ThreadJudge {
             Arrays.fill(open, 0);
             Arrays.fill(started, 0, objects * INSTANCE_WORDS, 0L);
             Arrays.fill(started, OBJECTS * INSTANCE_WORDS, OBJECTS * INSTANCE_WORDS + WORDS, 0L);
-            Arrays.fill(heads, BAD);
+            for (int k = 0; k < instances; k++) {
+                heads[inst[N_METHOD][k]] = BAD;
+            }
+            for (int o = 0; o < objects; o++) {
+                heads[METHODS + obj[O_SITE][o]] = BAD;
+            }
             instances = 0;
             nodes = 0;
             objects = 0;
@@ -3442,8 +3448,8 @@ public final class ThreadJudge {
         // ---- methods
 
         private void fillLeads() {
-            Arrays.fill(calling, 0L);
-            Arrays.fill(starting, 0L);
+            Arrays.fill(calling, 0, p.size * 2, 0L);
+            Arrays.fill(starting, 0, p.size * 2, 0L);
             Arrays.fill(leading, 0L);
             for (int node = 0; node < flow.nodes; node++) {
                 int i = flow.instructionOf(node);
@@ -4180,7 +4186,7 @@ public final class ThreadJudge {
         }
 
         private void fillRaces() {
-            Arrays.fill(raced, 0L);
+            Arrays.fill(raced, 0, p.size * CODE_WORDS, 0L);
             races = 0;
             for (int a = 0; a < flow.nodes; a++) {
                 int f = accessed(a);
@@ -4835,10 +4841,10 @@ public final class ThreadJudge {
             flow = solved;
         }
 
-        /** Forgets a run that had so many things. */
-        void clean(int things) {
+        /** Forgets a run that had so many things, of a program that has so many instructions. */
+        void clean(int things, int size) {
             Arrays.fill(now, 0);
-            Arrays.fill(met, 0L);
+            Arrays.fill(met, 0, size * CODE_WORDS, 0L);
             Arrays.fill(begun, 0);
             Arrays.fill(left, 0, things * THREADS, 0);
             Arrays.fill(seen, 0, things * FIELDS * PLACE_MARKS, 0);
@@ -5022,7 +5028,7 @@ public final class ThreadJudge {
         }
 
         void open() {
-            clocks.clean(heap.things);
+            clocks.clean(heap.things, p.size);
             heap.clean();
             live = true;
             good = true;
