@@ -5080,12 +5080,15 @@ public final class ThreadJudge {
             return f;
         }
 
+        /** What stands in a place; 0 where there is no such place, as above a full stack. */
         private long valueAt(int f, int place) {
-            return values[f * PLACES + place];
+            return f >= 0 && place >= 0 && place < PLACES ? values[f * PLACES + place] : 0L;
         }
 
         private void put(int f, int place, long v) {
-            values[f * PLACES + place] = v;
+            if (f >= 0 && place >= 0 && place < PLACES) {
+                values[f * PLACES + place] = v;
+            }
         }
 
         /** Where what an instruction takes stands. */

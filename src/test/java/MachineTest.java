@@ -15,6 +15,7 @@ public final class MachineTest {
         clashes();
         deadlock();
         draws();
+        lastFrame();
         wrongInputs();
         Judged.end();
     }
@@ -617,5 +618,26 @@ public final class MachineTest {
         Judged.due("run", x.run(2000, 5), 0);
         x.load();
         Judged.due("gone", x.step(0), -1);
+    }
+
+    /** The last frame that there may be, with a full stack. */
+    private static void lastFrame() {
+        String full = "string \"a\"; ".repeat(8);
+        ThreadJudge x = Judged.loaded(Judged.main("class T extends Thread { method void run() { push 28; call void T.d(int); return; } static method void d(int) { load 0; ifle L; load 0; push 1; sub; call void T.d(int); return; L: "
+            + full + "goto M; M: virtual void Object.notify(); return; } }", "L: new T; virtual void Thread.start(); goto L;"));
+        x.analyse(0, 300);
+        x.begin();
+        for (int k = 0; k < 32; k++) {
+            x.step(0);
+        }
+        Judged.due("threads", x.count(19), 12);
+        for (int k = 0; k < 400 && x.state(11, 2) != x.method(18, 3) + 16; k++) {
+            Judged.due("step", x.step(11), 1);
+        }
+        Judged.due("frames", x.state(11, 1), 30);
+        Judged.due("stack", x.local(11, 17), 11);
+        Judged.due("state", x.state(11, 0), 0);
+        Judged.due("raises", x.step(11), 1);
+        Judged.due("uncaught", x.state(11, 3), 12);
     }
 }

@@ -1,0 +1,139 @@
+/** Programs as large as they may be: the last instruction, node, object, thing, thread and frame. */
+public final class LimitsTest {
+    public static void main(String[] args) {
+        nodes();
+        objects();
+        instances();
+        code();
+        things();
+        threads();
+        Judged.end();
+    }
+
+    private static String times(String what, int n) {
+        StringBuilder all = new StringBuilder();
+        for (int k = 0; k < n; k++) {
+            all.append(what.replace("#", "" + k));
+        }
+        return all.toString();
+    }
+
+    /** All that is told of a program, and some runs of it. */
+    private static void askAll(ThreadJudge x) {
+        for (int i = 0; i < x.count(6); i++) {
+            for (int place = -1; place < 19; place++) {
+                x.holds(i, place, 0);
+                x.kind(i, place, -2);
+            }
+            x.held(i, true, 0);
+            x.held(i, false, 0);
+            x.parallel(i, x.count(6) - 1);
+            x.calls(i, true, 0);
+        }
+        for (int o = 0; o < x.count(9); o++) {
+            for (int f = -7; f < x.count(4); f++) {
+                x.field(o, f, -1);
+            }
+            Judged.yes("site", x.object(o, 0) >= 0);
+        }
+        for (int m = 0; m < x.count(5); m++) {
+            x.way(m, 0);
+        }
+        for (int k = 0; k < 3; k++) {
+            x.begin();
+            x.run(2000, k);
+            x.run(2000, k);
+            Judged.yes("foreseen", x.foreseen());
+        }
+    }
+
+    /** 3,990 nodes and one instance too many; the stack is full at the last instruction but eight. */
+    private static void nodes() {
+        String full = times("push 1; pop; ", 51) + "push 1; push 1; push 1; push 1; push 1; push 1; push 1; push 1; goto L; L: pop; pop; pop; pop; pop; pop; pop; pop; return; ";
+        for (int calls = 32; calls <= 34; calls++) {
+            ThreadJudge x = Judged.loaded(Judged.main("class A { static method void m() { " + full + "} }", times("call void A.m(); ", calls) + "return;"));
+            int n = x.method(17, 4);
+            Judged.due("lines of m", n, 120);
+            boolean much = calls * 120 + calls + 1 > 4000;
+            Judged.due("instances", x.analyse(1, 300), much ? 2 : calls + 1);
+            Judged.due("degraded", x.count(16), much ? 1 : 0);
+            Judged.due("nodes", x.count(11), much ? 120 + calls + 1 : calls * 120 + calls + 1);
+            askAll(x);
+        }
+    }
+
+    /** Sites of A.m by contexts: as many as there may be, and one more. */
+    private static void objects() {
+        for (int more = 0; more < 2; more++) {
+            String makes = times("new Object; pop; ", 58);
+            String text = "class A { static method void k() { " + times("new Object; pop; ", more) + "return; } method void m() { " + makes + "return; } } "
+                + Judged.main("", times("new A; virtual void A.m(); ", 8) + "string \"a\"; pop; " + times("call void A.k(); ", more) + times("string \"b#\"; pop; ", 6) + "return;");
+            ThreadJudge x = Judged.loaded(text);
+            x.analyse(2, 300);
+            // 58 by 8, 8 receivers, 7 strings, NullPointer: 480
+            Judged.due("objects", x.count(9), more == 0 ? 480 : 58 + 8 + 7 + 1 + 1);
+            Judged.due("degraded", x.count(16), more);
+            askAll(x);
+        }
+    }
+
+    private static void instances() {
+        String body = "return; ";
+        String text = "class A { static method void m() { " + body + "} } class B { " + times("static method void b#() { " + times("call void A.m(); ", 60) + "return; } ", 5) + "} "
+            + Judged.main("", "call void B.b0(); call void B.b1(); call void B.b2(); call void B.b3(); call void B.b4(); return;");
+        ThreadJudge x = Judged.loaded(text);
+        Judged.due("306 are too many", x.analyse(1, 300), 7);
+        Judged.due("degraded", x.count(16), 1);
+        text = text.replace("call void B.b4(); ", "") .replace("call void B.b3(); ", "call void B.b3(); " + times("call void A.m(); ", 55));
+        x = Judged.loaded(text);
+        Judged.due("just 300", x.analyse(1, 300), 300);
+        Judged.due("not degraded", x.count(16), 0);
+        askAll(x);
+        Judged.due("299 granted", x.analyse(1, 299), 6);
+    }
+
+    private static void code() {
+        String text = "class A { " + times("field int f#; ", 39) + times("static method void m#() { " + times("null; null; null; null; null; null; null; null; goto L#; L#: pop; pop; pop; pop; pop; pop; pop; pop; ", 6) + "return; } ", 9) + "} "
+            + Judged.main("", times("push 2; pop; ", 26) + "return;");
+        ThreadJudge x = Judged.loaded(text);
+        Judged.due("fields", x.count(4), 40);
+        x.analyse(3, 300);
+        askAll(x);
+    }
+
+    private static void things() {
+        ThreadJudge x = Judged.loaded(Judged.main("", "push 16; array Object; putstatic Main.r; L: push 16; array Object; dup; push 15; getstatic Main.r; setelement; dup; push 15; element; pop; putstatic Main.r; goto L;").replace("class Main {", "class Main { static field Object[] r;"));
+        x.analyse(0, 300);
+        x.begin();
+        for (int k = 0; k < 4; k++) {
+            x.run(2000, k);
+        }
+        Judged.due("things", x.count(18), 400);
+        Judged.due("last element", x.value(399, -16), 398);
+        Judged.due("no element", x.value(399, -17), -1);
+        Judged.due("of the last", x.thing(399, 2), 16);
+        askAll(x);
+    }
+
+    private static void threads() {
+        String full = times("getstatic Main.o; ", 8);
+        ThreadJudge x = Judged.loaded(Judged.main("class T extends Thread { method void run() { push 28; call void T.d(int); return; } static method void d(int) { getstatic Main.o; store 1; load 1; enter; load 0; ifle L; load 0; push 1; sub; call void T.d(int); M: load 1; exit; return; L: "
+            + full + "goto K; K: virtual void Object.wait(); virtual void Object.notify(); pop; pop; pop; pop; pop; pop; goto M; } }",
+            "new Object; putstatic Main.o; L: new T; virtual void Thread.start(); getstatic Main.n; push 1; add; dup; putstatic Main.n; push 11; cmplt L; N: getstatic Main.o; enter; getstatic Main.o; virtual void Object.notifyAll(); getstatic Main.o; exit; goto N;").replace("class Main {", "class Main { static field Object o; static field int n;"));
+        x.analyse(0, 300);
+        for (int draw = 0; draw < 6; draw++) {
+            x.begin();
+            for (int k = 0; k < 12; k++) {
+                x.run(2000, draw * 31 + k);
+                for (int t = 0; t < x.count(19); t++) {
+                    for (int what = 0; what < 5; what++) {
+                        x.state(t, what);
+                    }
+                    x.local(t, 17);
+                }
+            }
+            Judged.due("threads", x.count(19), 12);
+            Judged.yes("foreseen", x.foreseen());
+        }
+    }
+}
