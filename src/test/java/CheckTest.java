@@ -32,7 +32,7 @@ public final class CheckTest {
         wrong(21, "push 1; push 1; push 1; push 1; push 1; push 1; push 1; push 1; @dup; return;");
         fine("push 1; push 1; push 1; push 1; push 1; push 1; push 1; push 1; neg; add; return;");
         wrong(21, "push 1; @call void A.t(A, int); return;");
-        wrong(22, "push 1; push 1; @ifeq L; pop; L: return;".replace("@ifeq L; pop; L:", "ifeq L; @pop; L:"));
+        wrong(22, "push 1; push 1; ifeq L; @pop; L: return;");
         wrong(22, "L: push 1; push 1; @ifeq L; return;");
         wrong(22, "getstatic A.s; ifnull X; goto H; X: A: @push 1; pop; B: H: return; catch Throwable A B H;");
         fine("getstatic A.s; ifnull E; push 1; goto F; E: push 2; F: pop; return;");
@@ -77,7 +77,7 @@ public final class CheckTest {
         wrong(23, "new A; @virtual void B.m(); return;");
         wrong(23, "new A; new A; @call void A.t(A, int); return;");
         fine("null; push 1; call void A.t(A, int); call A A.ga(); push 1; call void A.t(A, int); return;");
-        wrong(23, "null; push 1; push 1; @setelement; new A; push 1; @element; pop; return;".replace("null; push 1; push 1; @setelement; ", "null; push 1; push 1; setelement; "));
+        wrong(23, "null; push 1; push 1; setelement; new A; push 1; @element; pop; return;");
         wrong(23, "push 2; array int; push 0; null; @setelement; return;");
         wrong(23, "push 2; array A; push 0; push 1; @setelement; return;");
         fine("push 2; array A; push 0; new Object; setelement; push 2; array int; push 0; element; neg; pop; null; length; pop; return;");

@@ -100,7 +100,7 @@ public final class MachineTest {
 
     private static void things() {
         ThreadJudge x = begun(Judged.main("class A { field int n; field A a; static field int s; static field A t; } class B extends A { field B b; }",
-            "new B; dup; push 7; put A.n; dup; dup; put A.a; putstatic A.t; push 3; array A; dup; push 2; getstatic A.t; setelement; push 2; array int; dup; push 1; push 5; setelement; string \"a\"; string \"a\"; string \"b\"; pop; pop; pop; lambda Runnable void Main.main(); length L; return;".replace("length L", "pop")));
+            "new B; dup; push 7; put A.n; dup; dup; put A.a; putstatic A.t; push 3; array A; dup; push 2; getstatic A.t; setelement; push 2; array int; dup; push 1; push 5; setelement; string \"a\"; string \"a\"; string \"b\"; pop; pop; pop; lambda Runnable void Main.main(); pop; return;"));
         x.run(100, 1);
         Judged.due("things", x.count(18), 6);
         int m = x.method(17, 3);
@@ -270,7 +270,7 @@ public final class MachineTest {
         Judged.due("goes on", x.state(1, 0), 0);
         Judged.due("enters", x.step(1), 1);
         Judged.due("by", x.thing(0, 4), 1);
-        raises("", "new Main; store 1; new Main; store 2; load 1; enter; load 2; enter; load 1; exit; load 2; exit;".replace("A: ", ""), 12, true);
+        raises("", "new Main; store 1; new Main; store 2; load 1; enter; load 2; enter; load 1; exit; load 2; exit;", 12, true);
         // a 'synchronized' run enters by a step of its own
         x = begun(Judged.main("class T extends Thread { synchronized method void run() { return; } }", "new T; dup; store 1; virtual void Thread.start(); load 1; enter; load 1; exit; return;"));
         for (int k = 0; k < 6; k++) {
@@ -342,9 +342,6 @@ public final class MachineTest {
 
     private static void threads() {
         ThreadJudge x = begun(Judged.main("class T extends Thread { method void run() { new Cast; throw; } synchronized method void uncaught(Throwable) { load 1; is Cast;" + P + "new State; throw; } } class N extends Ab { } abstract class Ab extends Thread { abstract method void run(); }",
-            "new T; store 1; load 1; virtual void Thread.join(); load 1; virtual void Thread.start(); A: load 1; virtual void Thread.start(); B: return; H: is State;" + P + "load 1; virtual void Thread.join(); new N; virtual void Thread.start(); return; catch Throwable A B H;"));
-        x.run(7, 1);
-        x = begun(Judged.main("class T extends Thread { method void run() { new Cast; throw; } synchronized method void uncaught(Throwable) { load 1; is Cast;" + P + "new State; throw; } } class N extends Ab { } abstract class Ab extends Thread { abstract method void run(); }",
             "new T; store 1; load 1; virtual void Thread.join(); load 1; virtual void Thread.start(); A: load 1; virtual void Thread.start(); B: return; H: is State;" + P + "load 1; virtual void Thread.join(); new N; virtual void Thread.start(); return; catch Throwable A B H;"));
         for (int k = 0; k < 8; k++) {
             Judged.due("step " + k, x.step(0), 1);

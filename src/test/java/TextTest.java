@@ -144,15 +144,15 @@ public final class TextTest {
         Judged.fault(2, "class @class { }");
         Judged.fault(2, "class @push { }");
         Judged.fault(2, "class @int { }");
-        Judged.fault(2, "static@".replace("static@", "@static class A { }"));
+        Judged.fault(2, "@static class A { }");
         Judged.fine("abstract excluded abstract class A { } " + MAIN);
-        Judged.fault(2, "class A implements B extends@".replace("extends@", "@extends C { }"));
+        Judged.fault(2, "class A implements B @extends C { }");
         Judged.fault(2, "class A implements B, @{ }");
-        Judged.fault(2, "class A { field int @[; }".replace("@[", "[@;"));
+        Judged.fault(2, "class A { field int [@;; }");
         Judged.fault(2, "class A { field int[] a @, b; }");
-        Judged.fault(2, "class A { excluded@".replace("excluded@", "@excluded field int a; }"));
+        Judged.fault(2, "class A { @excluded field int a; }");
         Judged.fault(2, "class A { static @}");
-        Judged.fault(2, "class A { method void m(@int int); }".replace("(@int int)", "(int @int)"));
+        Judged.fault(2, "class A { method void m(int @int); }");
         Judged.fault(2, "class A { method void m(int,@) ; }");
         Judged.fault(2, "class A { method void m() @field int a; }");
         Judged.fault(2, "class A { method @static void m() ; }");
@@ -165,12 +165,12 @@ public final class TextTest {
         wrongLine(2, "get Main@;");
         wrongLine(2, "get Main.@get;");
         wrongLine(2, "virtual void Main.m@;");
-        wrongLine(2, "virtual @Main.m();".replace("@Main.m", "Main@.m"));
+        wrongLine(2, "virtual Main@.m();");
         wrongLine(2, "lambda Main Main@.m();");
         wrongLine(2, "catch A B C@;");
         wrongLine(2, "catch A B C D @E;");
         wrongLine(2, "array int@,;");
-        wrongLine(2, "static@;".replace("static@", "@static"));
+        wrongLine(2, "@static;");
         Judged.fault(2, MAIN + " @}");
     }
 
