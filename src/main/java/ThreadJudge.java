@@ -4223,8 +4223,9 @@ public final class ThreadJudge {
         }
 
         boolean isRace(int i, int j) {
-            int high = Math.max(i, j);
-            return (raced[Math.min(i, j) * CODE_WORDS + (high >> 6)] >>> (high & 63) & 1L) != 0;
+            int low = i < j ? i : j;
+            int high = i < j ? j : i;
+            return (raced[low * CODE_WORDS + (high >> 6)] >>> (high & 63) & 1L) != 0;
         }
 
         boolean isRacing(int m) {
@@ -4583,21 +4584,18 @@ public final class ThreadJudge {
             term[0] = 0L;
             term[1] = 0L;
             for (int m = 0; m < p.methods; m++) {
-                if (isOf(word, m)) {
+                boolean is = word == W_ALL || word == W_MAIN && m == p.main;
+                switch (word) {
+                    case W_REACHED: is = t.isReached(m); break;
+                    case W_NATIVE: is = p.hasFlag(m, NATIVE); break;
+                    case W_RACING: is = monitors.isRacing(m); break;
+                    case W_LOCKING: is = p.hasFlag(m, SYNCHRONIZED) || hasOp(m, ENTER); break;
+                    case W_STARTING: is = t.isStarting(m); break;
+                    default: break;
+                }
+                if (is) {
                     addBit(term, 0, m);
                 }
-            }
-        }
-
-        private boolean isOf(int word, int m) {
-            switch (word) {
-                case W_ALL: return true;
-                case W_MAIN: return m == p.main;
-                case W_REACHED: return t.isReached(m);
-                case W_NATIVE: return p.hasFlag(m, NATIVE);
-                case W_RACING: return monitors.isRacing(m);
-                case W_LOCKING: return p.hasFlag(m, SYNCHRONIZED) || hasOp(m, ENTER);
-                default: return t.isStarting(m);
             }
         }
 
@@ -4857,7 +4855,9 @@ public final class ThreadJudge {
 
         private void join(int[] to, int a, int[] from, int b) {
             for (int u = 0; u < THREADS; u++) {
-                to[a + u] = Math.max(to[a + u], from[b + u]);
+                if (from[b + u] > to[a + u]) {
+                    to[a + u] = from[b + u];
+                }
             }
         }
 
