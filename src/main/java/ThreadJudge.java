@@ -4764,10 +4764,11 @@ public final class ThreadJudge {
             return n >= 0 && thing[H_OWNER][n] >= 0 && thing[H_OWNER][n] != t;
         }
 
+        /** How many classes began, those at their beginning too. */
         int begunCount() {
             int n = 0;
             for (int c = 0; c < p.classes; c++) {
-                n += begun[c] == BEGUN ? 1 : 0;
+                n += begun[c] != NOT_BEGUN ? 1 : 0;
             }
             return n;
         }

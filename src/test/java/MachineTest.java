@@ -215,24 +215,26 @@ public final class MachineTest {
         ThreadJudge x = begun("class A { static method void <clinit>() { push 1;" + P + "return; } } class Main extends A { static method void <clinit>() { push 2;" + P + "return; } static method void main() { push 3;" + P + "return; } }");
         Judged.due("frames", x.state(0, 1), 3);
         Judged.due("A's clinit", x.state(0, 3), 17);
-        Judged.due("begun", x.count(23), 1);
+        Judged.due("began, those at their beginning too", x.count(23), 3);
         x.run(3, 1);
         Judged.due("Main's clinit", x.state(0, 3), 18);
-        Judged.due("begun", x.count(23), 3);
+        Judged.due("began", x.count(23), 4);
         x.run(100, 1);
         Judged.due("said", x.said(0) * 100 + x.said(1) * 10 + x.said(2), 123);
         x = begun("class Main { static method void <clinit>() { new Cast; throw; } static method void main() { push 3;" + P + "return; } }");
         x.run(100, 1);
         Judged.due("ended", x.state(0, 0), 4);
         Judged.due("nothing said", x.count(20), 0);
-        Judged.due("Main has begun", x.count(23), 4);
+        Judged.due("began, each once", x.count(23), 4);
         // another thread waits for the class
         x = begun(Judged.main("class T extends Thread { method void run() { getstatic C.n; pop; return; } } class C { static field int n; static method void <clinit>() { push 1; putstatic C.n; return; } }",
             "new T; virtual void Thread.start(); getstatic C.n; pop; return;"));
         x.step(0);
         x.step(0);
+        Judged.due("began: Main, Object, T, Thread", x.count(23), 4);
         Judged.due("frames come", x.step(0), 1);
         Judged.due("frames", x.state(0, 1), 2);
+        Judged.due("C began by that step", x.count(23), 5);
         Judged.due("waits for a class", x.state(1, 0), 3);
         Judged.due("waits for no thing", x.state(1, 4), -1);
         Judged.due("does nothing", x.step(1), 0);
