@@ -6,6 +6,7 @@ public final class MachineTest {
         things();
         machineThrows();
         classesBegin();
+        classesBeginAheadOfLocks();
         monitors();
         waiting();
         threads();
@@ -246,6 +247,38 @@ public final class MachineTest {
         Judged.due("done anew", x.state(0, 2), x.method(19, 3) + 2);
         x.run(20, 1);
         Judged.due("all ended", x.state(0, 0) * 10 + x.state(1, 0), 44);
+    }
+
+    /** A lambda lets no class begin: the LOCK of a class can be taken before the class begins. */
+    private static void classesBeginAheadOfLocks() {
+        String classes = "class C { @ static synchronized method void m() { a: goto a; } static synchronized method void n() { return; } }";
+        String lines = "new Thread; dup; lambda Runnable void C.m(); special void Thread.<init>(Runnable); virtual void Thread.start(); call void C.n(); return;";
+        ThreadJudge x = begun(Judged.main(classes.replace("@", "static method void <clinit>() { return; }"), lines));
+        takeLock(x);
+        Judged.due("C begins ahead of the LOCK", x.state(0, 0), 0);
+        Judged.due("its clinit's frame comes", x.step(0), 1);
+        Judged.due("frames", x.state(0, 1), 2);
+        Judged.due("began", x.count(23), 4);
+        x.step(0);
+        Judged.due("has begun: waits for the LOCK", x.state(0, 0), 1);
+        Judged.due("of the CLASS", x.state(0, 4), 2);
+        Judged.due("does nothing", x.step(0), 0);
+        Judged.due("began", x.count(23), 4);
+        x = begun(Judged.main(classes.replace("@", ""), lines));
+        takeLock(x);
+        Judged.due("waits for the LOCK", x.state(0, 0), 1);
+        Judged.due("does nothing", x.step(0), 0);
+        Judged.due("so C did not begin", x.count(23), 3);
+    }
+
+    private static void takeLock(ThreadJudge x) {
+        Judged.due("up to start", x.run(9, 0), 9);
+        for (int k = 0; k < 6; k++) {
+            Judged.due("step of run", x.step(1), 1);
+        }
+        Judged.due("began: Main, Object, Thread", x.count(23), 3);
+        Judged.due("the CLASS is a thing", x.thing(2, 1), 3019);
+        Judged.due("its LOCK is taken", x.thing(2, 4), 1);
     }
 
     private static void monitors() {
