@@ -5,7 +5,7 @@ import java.util.List;
 
 /**
  * Programs of src/test/data/agreed.txt: all that is answered about each, against sums of answers on which this class and
- * a second implementation, written apart from it by the document alone, agreed. A line there is: the instances granted,
+ * a second implementation in another language agreed. A line there is: the instances granted,
  * the draw, the fault and its place, the sum of the program and of each policy's analysis and runs (none behind a fault),
  * a bar, the text. With an argument the lines are told with the sums as they are now.
  */
