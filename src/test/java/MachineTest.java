@@ -663,9 +663,10 @@ public final class MachineTest {
             x.step(0);
         }
         Judged.due("threads", x.count(19), 12);
-        for (int k = 0; k < 400 && x.state(11, 2) != x.method(18, 3) + 16; k++) {
+        for (int k = 0; k < 181; k++) {
             Judged.due("step", x.step(11), 1);
         }
+        Judged.due("instruction", x.state(11, 2), x.method(18, 3) + 16);
         Judged.due("frames", x.state(11, 1), 30);
         Judged.due("stack", x.local(11, 17), 11);
         Judged.due("state", x.state(11, 0), 0);

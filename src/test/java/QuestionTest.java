@@ -12,6 +12,12 @@ public final class QuestionTest {
         Judged.end();
     }
 
+    private static void anew() {
+        x = Judged.loaded("class A { method void gets() { return; } static method void <clinit>() { return; } static synchronized method void s() { call void A.t(); return; } static method void t() { null; enter; null; exit; getstatic Main.n; pop; return; } } "
+            + "class T extends Thread { method void run() { push 1; putstatic Main.n; call void A.s(); return; } } class Main { static field int n; static method void main() { new T; virtual void Thread.start(); call void A.t(); return; } }");
+        x.analyse(0, 300);
+    }
+
     private static void asking() {
         Judged.due("not analysed", Judged.ask(x, "all"), -1000);
         Judged.due("the question stays", x.ask('|'), 4);
@@ -52,9 +58,7 @@ public final class QuestionTest {
         is("locking", 20, 21);
         is("reached", 17);
         is("starting");
-        x = Judged.loaded("class A { method void gets() { return; } static method void <clinit>() { return; } static synchronized method void s() { call void A.t(); return; } static method void t() { null; enter; null; exit; getstatic Main.n; pop; return; } } "
-            + "class T extends Thread { method void run() { push 1; putstatic Main.n; call void A.s(); return; } } class Main { static field int n; static method void main() { new T; virtual void Thread.start(); call void A.t(); return; } }");
-        x.analyse(0, 300);
+        anew();
         // gets 17, clinit 18, s 19, t 20, run 21, main 22; uncaught 12
         is("reached", 12, 18, 19, 20, 21, 22);
         is("racing", 20, 21);
@@ -68,6 +72,7 @@ public final class QuestionTest {
     }
 
     private static void sums() {
+        anew();
         is("A | T - A.t", 17, 18, 19, 21);
         is("A - A.t | T & main", 17, 18, 19);
         is("A & reached - A.s", 18, 20);
@@ -85,6 +90,7 @@ public final class QuestionTest {
     }
 
     private static void faults() {
+        anew();
         wrong("", 0);
         wrong("   ", 3);
         wrong("A |", 3);
@@ -97,6 +103,7 @@ public final class QuestionTest {
         wrong("| A", 0);
         wrong("A && T", 3);
         wrong("(A", 2);
+        anew();
         wrong("A)", 1);
         wrong("()", 1);
         wrong("callers A", 8);

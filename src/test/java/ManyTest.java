@@ -1,0 +1,315 @@
+/** Rows that are long: many objects, instances, methods, instructions, threads, each of which is asked for by its number. */
+public final class ManyTest {
+    public static void main(String[] args) {
+        objectsInOnePlace();
+        objectsByContexts();
+        selectedOfMany();
+        manyMethods();
+        manyInstances();
+        manyThreads();
+        longMain();
+        longWays();
+        heldOfMany();
+        knotsOfMany();
+        racesOfMany();
+        stringsClassesMethods();
+        fourThousand();
+        Judged.end();
+    }
+
+    private static String times(String what, int n) {
+        StringBuilder all = new StringBuilder();
+        for (int k = 0; k < n; k++) {
+            all.append(what.replace("#", "" + k));
+        }
+        return all.toString();
+    }
+
+    private static ThreadJudge of(int policy, String text) {
+        ThreadJudge x = Judged.loaded(text);
+        x.analyse(policy, 300);
+        return x;
+    }
+
+    /** 116 objects in one static field, and those of them that a class fits. */
+    private static void objectsInOnePlace() {
+        String makes = times("new A; putstatic Main.o; new B; putstatic Main.o; ", 29);
+        ThreadJudge x = of(0, "class A { } class B { } class M { static method void m() { " + makes + "return; } static method void n() { " + makes + "return; } } class Main { static field Object o; static method void main() { call void M.m(); call void M.n(); getstatic Main.o; dup; cast A; pop; cast B; return; } }");
+        int get = x.count(6) - 6;
+        Judged.due("objects", x.count(9), 117);
+        Judged.due("all", x.holds(get + 1, 10, -1), 116);
+        for (int k = 0; k < 116; k++) {
+            Judged.due("k-th " + k, x.holds(get + 1, 10, k), k);
+            Judged.due("in the field " + k, x.field(0, 1, k), k);
+        }
+        Judged.due("no more", x.holds(get + 1, 10, 116), -1);
+        Judged.due("A's", x.holds(get + 3, 11, -1), 58);
+        Judged.due("B's", x.holds(get + 5, 10, -1), 58);
+        for (int k = 0; k < 58; k++) {
+            Judged.due("A " + k, x.holds(get + 3, 11, k), k * 2);
+            Judged.due("B " + k, x.holds(get + 5, 10, k), k * 2 + 1);
+        }
+    }
+
+    private static String contexts(int strings) {
+        return "class A { method void m() { " + times("new Object; putstatic Main.o; ", 58) + "return; } } class Main { static field Object o; static field Object[] r; static method void main() { "
+            + times("new A; virtual void A.m(); ", 8) + times("string \"#\"; putstatic Main.o; ", strings) + "push 1; array Object; putstatic Main.r; getstatic Main.r; push 0; getstatic Main.o; setelement; getstatic Main.r; push 0; element; return; } }";
+    }
+
+    /** "more than 480 objects": just 480 of them, by 8 contexts: all in one place, and in elements; then one more. */
+    private static void objectsByContexts() {
+        ThreadJudge x = of(2, contexts(3));
+        int last = x.count(6) - 1;
+        // of 8 contexts 58 each, 8 A, the array, 3 strings, what the machine throws
+        Judged.due("objects", x.count(9), 58 * 8 + 8 + 1 + 3 + 4);
+        Judged.due("not degraded", x.count(16), 0);
+        Judged.due("all of the field", x.holds(last, 10, -1), 464 + 3);
+        for (int k = 0; k < 464; k += 7) {
+            Judged.due("k-th " + k, x.holds(last, 10, k), k);
+            Judged.due("site of " + k, x.object(k, 0), 14 + k / 8 * 2);
+            Judged.due("escapes", x.object(k, 4), 1);
+        }
+        for (int k = 0; k < 8; k++) {
+            Judged.due("context " + k, x.object(k, 1), x.method(18, 3) + k * 2);
+        }
+        for (int k = 464; k < 467; k++) {
+            Judged.due("string " + k, x.object(x.holds(last, 10, k), 0), 2000 + k - 464);
+        }
+        Judged.due("no more", x.holds(last, 10, 467), -1);
+        Judged.due("elements", x.field(x.holds(last - 2, 10, 0), -1, -1), 467);
+        x = of(2, contexts(4));
+        Judged.due("degraded", x.count(16), 1);
+        Judged.due("without contexts", x.count(9), 58 + 8 + 1 + 4 + 4);
+        Judged.due("by policy 0", x.object(0, 1), -1);
+        Judged.due("by policy 3 there is one context of m", x.analyse(3, 300) * 10 + x.count(16), 20);
+    }
+
+    /** A call on 70 objects of two classes. */
+    private static void selectedOfMany() {
+        ThreadJudge x = of(0, "class A { method void m() { return; } } class B extends A { method void m() { return; } } class Main { static field A o; static method void main() { " + times("new A; putstatic Main.o; ", 54) + " call void Main.b(); getstatic Main.o; virtual void A.m(); return; } static method void b() { " + times("new B; putstatic Main.o; ", 30) + " return; } }");
+        Judged.due("A's m", x.holds(14, 0, -1), 54);
+        Judged.due("B's m", x.holds(15, 0, -1), 30);
+        Judged.due("first", x.holds(15, 0, 0), 54);
+        Judged.due("last", x.holds(15, 0, 29), 83);
+        Judged.due("calls", x.calls(x.method(19, 3) + 110, false, -1), 2);
+    }
+
+    /** 117 methods: sets of them, and ways. */
+    private static void manyMethods() {
+        String text = "class A { " + times("static method void a#() { call void A.b#(); return; } static method void b#() { return; } ", 49) + "} class Main { static method void main() { " + times("call void A.a#(); ", 49) + "return; } }";
+        ThreadJudge x = of(0, text);
+        Judged.due("methods", x.count(5), 116);
+        Judged.due("all", Judged.ask(x, "all"), 116);
+        for (int k = 0; k < 116; k += 3) {
+            Judged.due("all " + k, x.answered(k), k);
+        }
+        Judged.due("callers", Judged.ask(x, "callers(callees(A)) & A"), 49);
+        Judged.due("the last", x.answered(48), 17 + 96);
+        Judged.due("from main", Judged.ask(x, "from(main) - main"), 98);
+        Judged.due("into the last", Judged.ask(x, "into(A.b48)"), 3);
+        Judged.due("b", x.answered(1), 114);
+        Judged.due("a", x.answered(0), 113);
+        Judged.due("main", x.answered(2), 115);
+        for (int k = 0; k < 49; k += 4) {
+            Judged.due("way to b " + k, x.way(18 + 2 * k, -1), 2);
+            Judged.due("first", x.way(18 + 2 * k, 0), x.method(115, 3) + k);
+            Judged.due("second", x.way(18 + 2 * k, 1), 14 + k * 3);
+            Judged.due("calls", x.calls(x.method(115, 3) + k, false, 0), 17 + 2 * k);
+            Judged.due("once", x.reached(18 + 2 * k, 1), 1);
+        }
+        // one instruction that calls many
+        text = times("class K# extends K { method void m() { return; } } ", 18) + "class K { method void m() { return; } static field K k; } " + "class L { " + times("static method void x#() { return; } ", 60) + "} class Main { static method void main() { " + times("new K#; putstatic K.k; ", 18) + "getstatic K.k; virtual void K.m(); return; } }";
+        x = of(0, text);
+        int call = x.count(6) - 2;
+        Judged.due("calls", x.calls(call, false, -1), 18);
+        for (int k = 0; k < 18; k++) {
+            Judged.due("k-th", x.calls(call, false, k), 17 + k);
+        }
+        x = of(0, "class L { " + times("static method void x#() { return; } ", 70) + "} " + times("class K# extends K { method void m() { return; } } ", 18) + "class K { static field K k; method void m() { return; } } class Main { static method void main() { " + times("new K#; putstatic K.k; ", 18) + "getstatic K.k; virtual void K.m(); return; } }");
+        call = x.count(6) - 2;
+        Judged.due("calls", x.calls(call, false, -1), 18);
+        for (int k = 0; k < 18; k++) {
+            Judged.due("k-th", x.calls(call, false, k), 87 + k);
+        }
+        Judged.due("no more", x.calls(call, false, 18), -1);
+        Judged.due("x's are not reached", Judged.ask(x, "L & reached"), 0);
+        Judged.due("others are", Judged.ask(x, "reached"), 19);
+    }
+
+    /** 300 instances, of which a thread runs some. */
+    private static void manyInstances() {
+        String text = "class A { static method void m() { push 1; putstatic Main.n; return; } } class B { static method void b0() { " + times("call void A.m(); ", 100) + "return; } static method void b1() { " + times("call void A.m(); ", 100) + "return; } } "
+            + "class T extends Thread { method void run() { call void B.b0(); return; } } class Main { static field int n; static method void main() { new T; virtual void Thread.start(); call void B.b1(); " + times("call void A.m(); ", 94) + "return; } }";
+        ThreadJudge x = of(1, text);
+        // main, run, uncaught, b0, b1, and 294 of m
+        Judged.due("instances", x.count(8), 299);
+        Judged.due("of m", x.reached(17, 0), 294);
+        Judged.due("thread 0", x.thread(0, 2), 1 + 1 + 100 + 94);
+        Judged.due("thread 1", x.thread(1, 2), 1 + 1 + 1 + 100);
+        Judged.due("m with m", x.parallel(15, 15), 1);
+        Judged.due("a race", x.count(12), 1);
+        String later = text.replace("new T; virtual void Thread.start(); call void B.b1();", "call void B.b1();");
+        x = of(1, later.substring(0, later.lastIndexOf("return;")) + "new T; virtual void Thread.start(); return; } }");
+        Judged.due("started behind all calls", x.parallel(15, 15), 0);
+    }
+
+    /** 100 threads that there may be. */
+    private static void manyThreads() {
+        String starts = times("new T; virtual void Thread.start(); ", 39);
+        ThreadJudge x = of(0, "class T extends Thread { method void run() { push 1; pop; return; } } class M { static method void m() { " + starts + "return; } static method void n() { " + starts + "return; } } class Main { static method void main() { call void M.m(); call void M.n(); new T; virtual void Thread.start(); return; } }");
+        Judged.due("threads", x.count(10), 80);
+        for (int t = 1; t < 80; t++) {
+            Judged.due("object of " + t, x.thread(t, 0), t - 1);
+            Judged.due("thread of its object", x.object(t - 1, 5), t);
+            Judged.due("single", x.thread(t, 1), 1);
+            Judged.due("runs", x.thread(t, 2), 2);
+        }
+        Judged.due("no more", x.thread(80, 0), -1);
+        Judged.due("run with itself", x.parallel(14, 14), 1);
+        Judged.due("main ahead of all starts", x.parallel(x.count(6) - 5, 14), 1);
+        // one thread of its own class behind many others
+        x = of(0, "class T extends Thread { } class U extends Thread { method void run() { return; } } class M { static method void m() { " + starts + "return; } static method void n() { " + starts + "return; } } class Main { static method void main() { call void M.m(); call void M.n(); new U; virtual void Thread.start(); return; } }");
+        Judged.due("threads", x.count(10), 80);
+        int last = x.count(6) - 1;
+        Judged.due("main before U", x.parallel(last - 1, 14), 0);
+        Judged.due("main behind its start", x.parallel(last, 14), 1);
+        Judged.due("U with itself", x.parallel(14, 14), 0);
+        Judged.due("U with the others", x.parallel(14, 6), 1);
+    }
+
+    /** What is before and behind a thread, where MAIN is long. */
+    private static void longMain() {
+        String t = "class T extends Thread { method void run() { return; } } class W { static method void w() { return; } } ";
+        for (int more = 0; more <= 48; more += 6) {
+            String lines = times("push 1; pop; ", more) + "new T; store 1; load 1; virtual void Thread.start(); " + times("push 1; pop; ", 48 - more) + "load 1; virtual void Thread.join(); call void W.w(); push 1; pop; return;";
+            ThreadJudge x = of(0, Judged.main(t, lines));
+            int first = x.method(19, 3);
+            int start = first + more * 2 + 3;
+            int join = first + 96 + 5;
+            for (int i = first; i < x.count(6); i++) {
+                Judged.due("instruction " + (i - first) + " of " + more, x.parallel(i, 14), i > start && i <= join ? 1 : 0);
+            }
+            Judged.due("w is behind", x.parallel(15, 14), 0);
+            x = of(0, Judged.main(t, lines.replace("call void W.w(); push 1;", "push 1;").replaceFirst("push 1; pop;", "call void W.w();")));
+            Judged.due("w between or before", x.parallel(15, 14), more == 0 ? 1 : 0);
+        }
+    }
+
+    /** Ways from one instruction to another that is far. */
+    private static void longWays() {
+        for (int at = 0; at < 56; at += 5) {
+            String lines = times("push 1; pop; ", at) + "L: new A; pop; " + times("push 1; pop; ", 55 - at) + "push 1; ifeq L; new A; pop; return;";
+            ThreadJudge x = of(0, Judged.main("class A { } ", lines));
+            Judged.due("in the loop " + at, x.object(0, 3), 0);
+            Judged.due("behind it " + at, x.object(1, 3), 1);
+            lines = times("push 1; pop; ", at) + "new A; pop; L: " + times("push 1; pop; ", 55 - at) + "push 1; ifeq L; new A; pop; return;";
+            x = of(0, Judged.main("class A { } ", lines));
+            Judged.due("before it " + at, x.object(0, 3), 1);
+            Judged.due("behind it " + at, x.object(1, 3), 1);
+        }
+    }
+
+    /** Of 100 objects one that is held. */
+    private static void heldOfMany() {
+        String makes = times("new Object; pop; ", 59);
+        ThreadJudge x = of(0, "class M { static method void m() { " + makes + "return; } } " + Judged.main("", times("new Object; pop; ", 50) + "new Object; store 1; load 1; enter; load 1; virtual void Object.wait(); null; exit; return;"));
+        int wait = x.count(6) - 4;
+        Judged.due("objects", x.count(9), 51 + 2);
+        Judged.due("held", x.held(wait, true, 0), 50);
+        x = of(0, "class M { static method void m() { " + makes + "return; } } " + Judged.main("", "call void M.m(); " + times("new Object; pop; ", 50) + "new Object; store 1; load 1; enter; load 1; virtual void Object.wait(); null; exit; return;"));
+        wait = x.count(6) - 4;
+        Judged.due("objects", x.count(9), 110 + 2);
+        Judged.due("held", x.held(wait, true, 0), 109);
+        Judged.due("alone", x.held(wait, true, -1), 1);
+        Judged.due("may be held", x.held(wait, false, 0), 109);
+        Judged.due("rash, not loose", x.waits(0, 1), 2);
+    }
+
+    /** Knots of objects with great numbers. */
+    private static void knotsOfMany() {
+        String makes = times("new Object; pop; ", 50);
+        String both = "static method void go(Object, Object) { load 0; enter; load 1; enter; null; exit; null; exit; return; } ";
+        ThreadJudge x = of(1, "class M { static method void m() { " + makes + "return; } static method void n() { " + makes + "return; } } class Main { " + both + "static method void main() { call void M.m(); call void M.n(); new Object; store 1; new Object; store 2; new Thread; virtual void Thread.start(); load 1; load 2; call void Main.go(Object, Object); load 2; load 1; call void Main.go(Object, Object); return; } }");
+        Judged.due("knots", x.count(13), 2);
+        Judged.due("o", x.knot(0, 1), 100);
+        Judged.due("p", x.knot(0, 2), 101);
+        Judged.due("o", x.knot(1, 1), 101);
+        Judged.due("p", x.knot(1, 2), 100);
+        // a ring of 70 strings' worth: each holds one and wants the next
+        StringBuilder ring = new StringBuilder();
+        for (int k = 0; k < 32; k++) {
+            ring.append("string \"").append(k).append("\"; string \"").append((k + 1) % 32).append("\"; call void Main.go(Object, Object); ");
+        }
+        x = of(1, "class Main { " + both + "static method void main() { new Thread; virtual void Thread.start(); " + ring + "return; } }");
+        Judged.due("a ring of 32", x.count(13), 32);
+        for (int k = 0; k < 32; k++) {
+            Judged.due("o of " + k, x.object(x.knot(k, 1), 0), 2000 + k);
+            Judged.due("p of " + k, x.object(x.knot(k, 2), 0), 2000 + (k + 1) % 32);
+        }
+        x = of(1, "class Main { " + both + "static method void main() { new Thread; virtual void Thread.start(); " + ring.substring(0, ring.lastIndexOf("string \"31\"; ")) + "return; } }");
+        Judged.due("a row of 32", x.count(13), 0);
+    }
+
+    /** Races of instructions with great numbers. */
+    private static void racesOfMany() {
+        String puts = times("push 1; putstatic Main.n; ", 59);
+        ThreadJudge x = of(0, times("class C# { static method void m() { " + puts + "return; } } ", 7) + "class T extends Thread { method void run() { push 1; putstatic Main.n; return; } } class Main { static field int n; static method void main() { new T; virtual void Thread.start(); push 1; pop; push 1; putstatic Main.n; push 1; putstatic Main.n; return; } }");
+        int run = x.method(24, 3) + 1;
+        int put = x.method(25, 3) + 5;
+        Judged.due("two", x.count(12), 2);
+        Judged.due("first", x.race(0, 0), run);
+        Judged.due("with", x.race(0, 1), put);
+        Judged.due("second", x.race(1, 0), run);
+        Judged.due("with", x.race(1, 1), put + 2);
+        Judged.yes("great numbers: " + put, put > 840);
+        Judged.due("racing", Judged.ask(x, "racing"), 2);
+        x.begin();
+        x.run(2000, 1);
+        Judged.due("clashes", x.count(21), 2);
+        Judged.due("lesser", x.clash(0, 0), run);
+        // each with each: 30 writings in two threads
+        x = of(0, "class T extends Thread { method void run() { " + times("push 1; putstatic Main.n; ", 30) + "return; } } class Main { static field int n; static method void main() { new T; virtual void Thread.start(); new T; virtual void Thread.start(); return; } }");
+        Judged.due("each with each", x.count(12), 30 * 31 / 2);
+        for (int k = 0; k < 30; k++) {
+            Judged.due("of the first", x.race(k, 1), 15 + k * 2);
+        }
+        Judged.due("then", x.race(30, 0) * 1000 + x.race(30, 1), 17017);
+        Judged.due("the last", x.race(464, 0) * 1000 + x.race(464, 1), 73073);
+    }
+
+    /** STRINGS, CLASSES, METHODS with great numbers, as objects and as things. */
+    private static void stringsClassesMethods() {
+        String text = "class A { " + times("method void a#() { return; } ", 29) + "} " + times("class C# { } ", 22) + "class Main { static method void main() { " + times("string \"C#\"; call Class Class.named(String); pop; ", 22).replace("C21", "A") + times("string \"a@\"; pop; ".replace("@", "1#"), 9) + "string \"A\"; call Class Class.named(String); string \"a18\"; virtual Method Class.find(String); return; } }";
+        ThreadJudge x = of(0, text);
+        Judged.due("classes", x.count(3), 43);
+        Judged.due("strings", x.count(7), 31);
+        for (int k = 0; k < 21; k++) {
+            Judged.due("CLASS", x.object(x.holds(x.method(46, 3) + k * 3 + 2, 10, 0), 0), 3020 + k);
+            Judged.due("begins", x.begins(20 + k), 1);
+        }
+        Judged.due("METHOD", x.object(x.holds(x.count(6) - 1, 10, 0), 0), 4017 + 18);
+        x.begin();
+        x.run(500, 1);
+        Judged.due("things", x.count(18), 31 + 22 + 1);
+        Judged.due("a CLASS", x.thing(3, 1), 3021);
+        Judged.due("the METHOD", x.thing(53, 1), 4035);
+        Judged.due("began", x.count(23), 22 + 3 + 1 - 1);
+        Judged.yes("foreseen", x.foreseen());
+    }
+
+    /** "or more than 4,000 instructions in all instances together (of each all of its method)" and "more than 480 objects", to the last one. */
+    private static void fourThousand() {
+        // 39 calls of a method of 100 instructions, and main
+        for (int more = 0; more < 3; more++) {
+            String text = "class A { static method void m() { " + times("push 1; pop; ", 49) + "goto L; L: return; } } "
+                + Judged.main("", times("call void A.m(); ", 39) + times("push 1; pop; ", 29) + "return; " + times("return; ", 1 + more));
+            ThreadJudge x = Judged.loaded(text);
+            boolean much = more == 2;
+            Judged.due("instances of " + more, x.analyse(1, 300), much ? 2 : 40);
+            Judged.due("degraded " + more, x.count(16), much ? 1 : 0);
+            Judged.due("instructions " + more, x.count(11), much ? 100 + 101 : 3999 + more);
+            x.analyse(0, 300);
+            Judged.due("by 0 not degraded", x.count(16), 0);
+        }
+    }
+}
