@@ -335,6 +335,10 @@ public final class ChecksTest {
         // as long, but of another 53
         wrong(26, "push 1; ifeq X; null; enter; goto L; X: null; @enter; L: null; exit; return;");
         wrong(26, "null; enter; push 1; ifeq X; null; enter; goto L; X: null; @enter; L: null; exit; null; exit; return;");
+        // by an instruction that is neither 53 nor a label's
+        wrong(26, "push 1; ifeq X; null; enter; push 1; pop; goto L; X: null; enter; push 1; @pop; L: null; exit; return;");
+        wrong(26, "push 1; ifeq X; null; enter; push 1; pop; L: null; exit; return; X: null; enter; push 1; pop; @goto L;");
+        wrong(26, "null; enter; push 1; ifeq X; null; exit; null; enter; push 1; pop; goto L; X: push 1; @pop; L: null; exit; return;");
         // the same 53s by another way are the same row
         fine("L: null; enter; push 1; ifeq X; null; exit; goto L; X: null; exit; return;");
         fine("null; enter; push 1; ifeq X; push 1; goto L; X: push 2; L: pop; null; exit; return;");
@@ -497,6 +501,11 @@ public final class ChecksTest {
             fine(right + "length; pop; return;");
         }
         fine(both + "ifnull E; E: return;");
+        // beside other things on the stack
+        leaves("push 9; null; push 1; array A; push 0; element;", "int", "NULL", "A");
+        leaves("push 9; null; push 1; array int; push 0; element;", "int", "NULL", "int");
+        leaves("push 1; array A; null;", "array", "NULL");
+        leaves("null; push 1; array int; push 1;", "NULL", "array", "int");
         ThreadJudge x = Judged.loaded(Judged.main(MORE, two + "push 0; element; return;"));
         int last = x.count(6) - 1;
         Judged.due("B", x.kind(last, 10, 21), 1);

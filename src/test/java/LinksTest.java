@@ -437,6 +437,11 @@ public final class LinksTest {
         }
         Judged.fault(12, "class A { static method void m() { L: return; } static method void n() { @goto L; } }" + MAIN);
         fine("class A { static method void m() { L: goto L; } static method void n() { L: goto L; } }");
+        // one that the next method tells, as its first or a later one
+        Judged.fault(12, "class A { static method void m() { @goto L; } static method void n() { L: goto L; } }" + MAIN);
+        Judged.fault(12, "class A { static method void m() { M: @goto L; } static method void n() { L: M: goto L; } }" + MAIN);
+        Judged.fault(12, "class A { static method void m() { M: @goto L; } static method void n() { K: L: goto L; } }" + MAIN);
+        Judged.fault(12, "class A { static method void m() { A: push 1; pop; B: return; @catch Throwable A B L; } static method void n() { L: goto L; } }" + MAIN);
         fineLine("goto L; A: push 1; ifeq A; return; L: M: goto A;");
         // a label at the end names what is behind the last instruction
         Judged.fault(20, "class Main { static method void @main() { goto L; L: } }");
@@ -592,10 +597,10 @@ public final class LinksTest {
 
     /** "52. it is not static, or native." .. "52: c is no interface" .. "the last parameters of m are not that one's, or m gives another type than that one" */
     private static void lambdas() {
-        String f = "interface F { abstract method int f(int, A); } interface V { abstract method void v(); } class A { static method int k(Object, int[], int, A) { push 1; give; } static method int e(int, A) { push 1; give; } static method int w(int, B) { push 1; give; } static method int s(int) { push 1; give; } static method int r(A, int) { push 1; give; } static method void n(int, A) { return; } static method Object o(int, A) { null; give; } static method void v() { return; } static method void p(int) { return; } method void m() { return; } static method void <clinit>() { return; } static method int t(int, Object) { push 1; give; } } class B extends A { } interface P { abstract method void p(int); } interface H { abstract method void h(Thread); } abstract class Abs { abstract method void v(); } ";
+        String f = "interface F { abstract method int f(int, A); } interface V { abstract method void v(); } class A { static method int k(Object, int[], int, A) { push 1; give; } static method int e(int, A) { push 1; give; } static method int w(int, B) { push 1; give; } static method int s(int) { push 1; give; } static method int r(A, int) { push 1; give; } static method void n(int, A) { return; } static method Object o(int, A) { null; give; } static method void v() { return; } static method void p(int) { return; } method void m() { return; } static method void <clinit>() { return; } static method int t(int, Object) { push 1; give; } static method int x(int[], A) { push 1; give; } static method int y(A, A) { push 1; give; } static method int z(int[], int, Object) { push 1; give; } } class B extends A { } interface P { abstract method void p(int); } interface H { abstract method void h(Thread); } abstract class Abs { abstract method void v(); } ";
         Judged.fine(Judged.main(f, "null; null; lambda F int A.k(Object, int[], int, A); lambda F int A.e(int, A); lambda V void A.v(); lambda V void B.v(); push 1; lambda V void A.p(int); lambda P void A.p(int); return;"));
         for (String wrong : new String[] {"A void A.v()", "Abs void A.v()", "Object void A.v()", "F int A.w(int, B)", "F int A.s(int)", "F int A.r(A, int)", "F void A.n(int, A)", "F Object A.o(int, A)",
-            "F int A.t(int, Object)", "V void A.m()", "P void Out.print(int)", "H void Runtime.hook(Thread)", "V void A.<clinit>()", "F void A.v()", "V void Object.notify()", "V int A.e(int, A)"}) {
+            "F int A.t(int, Object)", "F int A.x(int[], A)", "F int A.y(A, A)", "F int A.z(int[], int, Object)", "V void A.m()", "P void Out.print(int)", "H void Runtime.hook(Thread)", "V void A.<clinit>()", "F void A.v()", "V void Object.notify()", "V int A.e(int, A)"}) {
             Judged.fault(12, Judged.main(f, "@lambda " + wrong + "; pop; return;"));
         }
     }

@@ -7,6 +7,7 @@ public final class ManyTest {
         manyMethods();
         manyInstances();
         manyThreads();
+        startedOfMany();
         longMain();
         longWays();
         heldOfMany();
@@ -153,6 +154,45 @@ public final class ManyTest {
         Judged.due("started behind all calls", x.parallel(15, 15), 0);
     }
 
+    /** A method with a great number that is started, and what starts it. */
+    private static void startedOfMany() {
+        String many = times("class M# { " + times("method void a@#() { return; } ".replace("@", "_"), 12) + "} ", 5);
+        String t = "class T extends Thread { method void run() { call void T.r(); return; } static method void r() { return; } method void uncaught(Throwable) { call void T.u(); return; } static method void u() { return; } } ";
+        ThreadJudge x = of(0, many + t + Judged.main("class S { static method void s() { new T; virtual void Thread.start(); return; } } ", "call void S.s(); return;"));
+        int run = 17 + 60;
+        // run, r, uncaught, u, s, main
+        Judged.due("way to u", x.way(run + 3, -1), 3);
+        Judged.due("by main", x.way(run + 3, 0), x.method(run + 5, 3));
+        Judged.due("then s", x.way(run + 3, 1), x.method(run + 4, 3) + 1);
+        Judged.due("then uncaught", x.way(run + 3, 2), x.method(run + 2, 3));
+        Judged.due("starting", Judged.ask(x, "starting"), 1);
+        Judged.due("that is s", x.answered(0), run + 4);
+        Judged.due("callers of run", Judged.ask(x, "callers(T.run)"), 1);
+        Judged.due("that is s", x.answered(0), run + 4);
+        Judged.due("callees of s", Judged.ask(x, "callees(S)"), 2);
+        Judged.due("run", x.answered(0), run);
+        Judged.due("uncaught", x.answered(1), run + 2);
+        Judged.due("into u", Judged.ask(x, "into(T.u)"), 4);
+        Judged.due("from s", Judged.ask(x, "from(S)"), 5);
+        Judged.due("starts of it", x.calls(x.way(run + 3, 1), true, -1), 2);
+        Judged.due("run first", x.calls(x.way(run + 3, 1), true, 0), run);
+        Judged.due("starts, not calls", x.calls(x.way(run + 3, 1), false, -1), 0);
+        // only uncaught is started
+        x = of(0, many + "abstract class T extends Thread { abstract method void run(); } class U extends T { method void uncaught(Throwable) { return; } } " + Judged.main("", "new U; virtual void Thread.start(); return;"));
+        Judged.due("uncaught alone", x.calls(x.count(6) - 2, true, -1), 1);
+        Judged.due("that", x.calls(x.count(6) - 2, true, 0), run + 1);
+        Judged.due("main is starting", Judged.ask(x, "starting"), 1);
+        Judged.due("main", x.answered(0), run + 2);
+        Judged.due("way", x.way(run + 1, -1), 1);
+        Judged.due("thread 1", x.thread(1, 2), 1);
+        // nothing is: the thread is one all the same
+        x = of(0, many + "abstract class T extends Thread { abstract method void run(); abstract method void uncaught(Throwable); } class U extends T { } " + Judged.main("", "new U; virtual void Thread.start(); return;"));
+        Judged.due("none started", x.calls(x.count(6) - 2, true, -1), 0);
+        Judged.due("threads", x.count(10), 2);
+        Judged.due("runs none", x.thread(1, 2), 0);
+        Judged.due("nobody is starting", Judged.ask(x, "starting"), 0);
+    }
+
     /** 100 threads that there may be. */
     private static void manyThreads() {
         String starts = times("new T; virtual void Thread.start(); ", 39);
@@ -252,8 +292,7 @@ public final class ManyTest {
 
     /** Races of instructions with great numbers. */
     private static void racesOfMany() {
-        String puts = times("push 1; putstatic Main.n; ", 59);
-        ThreadJudge x = of(0, times("class C# { static method void m() { " + puts + "return; } } ", 7) + "class T extends Thread { method void run() { push 1; putstatic Main.n; return; } } class Main { static field int n; static method void main() { new T; virtual void Thread.start(); push 1; pop; push 1; putstatic Main.n; push 1; putstatic Main.n; return; } }");
+        ThreadJudge x = of(0, times("class C# { static method void m() { " + times("return;", 119) + " } } ", 7) + "class T extends Thread { method void run() { push 1; putstatic Main.n; return; } } class Main { static field int n; static method void main() { new T; virtual void Thread.start(); push 1; pop; push 1; putstatic Main.n; push 1; putstatic Main.n; return; } }");
         int run = x.method(24, 3) + 1;
         int put = x.method(25, 3) + 5;
         Judged.due("two", x.count(12), 2);

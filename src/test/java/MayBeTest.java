@@ -426,6 +426,16 @@ public final class MayBeTest {
         x = of(1, Judged.main(k, "string \"a\"; call int K.n(Object); pop; string \"b\"; call int K.n(Object); pop; return;"));
         Judged.due("apart by 1", x.reached(18, 0), 2);
         same("all instances together", at(x, 20, 0), "2000 2001 ");
+        // each call takes its own values, whatever stood on the stack for the one before
+        String six = "class K { static method void six(Object, Object, Object, Object, Object, Object) { return; } static method void one(Object) { return; } static method void two(Object, Object) { return; } static method Object given(Object, Object) { load 1; give; } } ";
+        x = of(0, Judged.main(six, "string \"a\"; string \"b\"; string \"c\"; string \"d\"; string \"e\"; string \"f\"; call void K.six(Object, Object, Object, Object, Object, Object); string \"g\"; call void K.one(Object); string \"h\"; string \"i\"; call void K.two(Object, Object); string \"j\"; string \"k\"; call Object K.given(Object, Object); pop; return;"));
+        for (int p = 0; p < 6; p++) {
+            same("of six, " + p, at(x, 14, p), 2000 + p + " ");
+        }
+        same("of one", at(x, 15, 0), "2006 ");
+        same("of two", at(x, 16, 0) + at(x, 16, 1), "2007 2008 ");
+        same("given", at(x, x.count(6) - 2, 10), "2010 ");
+        same("the rest has none", at(x, 16, 2) + at(x, 15, 1), "");
     }
 
     /** The classes of what the machine may throw at these lines, as they come to a catch of Throwable. */
@@ -465,6 +475,8 @@ public final class MayBeTest {
         same("53", at(x, x.count(6) - 1, 10), "5006 ");
         x = of(0, Judged.main("", "A: new Cast; throw; B: null; pop; return; H: return; catch Throwable A B H;"));
         same("what 55 takes", at(x, x.count(6) - 1, 10), "14 5006 ");
+        x = of(0, Judged.main("", "string \"a\"; enter; null; A: exit; B: return; H: null; exit; return; catch Throwable A B H;"));
+        same("54 alone", at(x, 19, 10), "5006 5012 ");
     }
 
     /** "wait, notify, notifyAll throw Monitor. named: .. NoClass and NullPointer are thrown in any case." .. "NoClass is thrown" .. "NoMethod and NullPointer are thrown" .. "Cast and NullPointer are thrown" .. "start throws State; hook NullPointer" */

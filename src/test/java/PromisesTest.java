@@ -24,6 +24,7 @@ public final class PromisesTest {
         instruction();
         below();
         selected();
+        selectedInit();
         kind();
         analyse();
         holds();
@@ -44,6 +45,7 @@ public final class PromisesTest {
         run();
         draws();
         state();
+        stateAnew();
         local();
         thing();
         value();
@@ -383,6 +385,17 @@ public final class PromisesTest {
         Judged.due("none", x.selected(0, 23), -1);
         Judged.due("static is none", x.selected(22, 23), -1);
         Judged.due("abstract is none", x.selected(19, 17), -1);
+    }
+
+    private static void selectedInit() {
+        ThreadJudge x = Judged.loaded(Judged.main("class A { method void <init>() { return; } } class B extends A { method void <init>(int) { return; } } class C extends B { } ", "return;"));
+        Judged.due("<init> of its own", x.selected(19, 0), 17);
+        Judged.due("of what it extends", x.selected(20, 0), 17);
+        Judged.due("again and again", x.selected(21, 0), 17);
+        Judged.due("by its own number", x.selected(21, 17), 17);
+        Judged.due("Thread's", x.selected(16, 17), 9);
+        Judged.due("with a parameter", x.selected(21, 18), 18);
+        Judged.due("not Object's", x.selected(0, 18), -1);
     }
 
     /** "Whether the SET of a place of the stack or of a local before an instruction has a kind .. BAD: none such; it is not come to." */
@@ -787,6 +800,31 @@ public final class PromisesTest {
             Judged.due("begun " + what, x.state(0, what), begun[what]);
         }
         Judged.due("no thread 1", x.state(1, 0), -1);
+    }
+
+    /** What another run had is none of this one's. */
+    private static void stateAnew() {
+        ThreadJudge x = Judged.loaded(Judged.main("class T extends Thread { static field Object o; method void run() { push 7; store 1; getstatic T.o; enter; getstatic T.o; virtual void Object.wait(); null; exit; return; } } ",
+            "new Object; putstatic T.o; new T; virtual void Thread.start(); new T; virtual void Thread.start(); return;"));
+        x.begin();
+        x.run(60, 5);
+        for (int t = 1; t < 3; t++) {
+            Judged.due("sleeps", x.state(t, 0), 2);
+            Judged.due("has a frame", x.state(t, 1), 1);
+            Judged.due("local", x.local(t, 1), 7);
+        }
+        x.begin();
+        for (int t = 1; t < 13; t++) {
+            for (int what = 0; what < 5; what++) {
+                Judged.due("none such any more", x.state(t, what), -1);
+            }
+            Judged.due("no local any more", x.local(t, 1), -1);
+            Judged.due("no step any more", x.step(t), 0);
+        }
+        Judged.due("no thing any more", x.thing(0, 0), -1);
+        Judged.due("no value any more", x.value(1, 0), -1);
+        Judged.due("static fields are null", x.value(0, 1), -1);
+        Judged.due("no frame that waits", x.state(0, 0) * 10 + x.state(0, 1), 1);
     }
 
     /** "A number, or a thing's number (null: BAD), in a place of the topmost frame of a thread, as for kind() (0 in a local that was never set). BAD: none such, no run." */

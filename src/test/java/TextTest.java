@@ -42,6 +42,12 @@ public final class TextTest {
         Judged.due("end(0)", x.end(0), 11979);
         Judged.due("feed again", x.feed(1, 2, 3, 4, 5), 11999);
         Judged.due("count(2)", x.count(2), 11999);
+        Judged.due("to 11,980", x.end(1), 11980);
+        Judged.due("just full", x.feed(1, 2, 3, 4, 5), 12000);
+        Judged.due("to 11,981", x.end(1), 11981);
+        Judged.due("one too many", x.feed(1, 2, 3, 4, 5), -1);
+        Judged.due("stays", x.count(2), 11981);
+        Judged.due("the last byte stays", x.change(11980, 9), 0);
         ThreadJudge y = new ThreadJudge();
         y.feed(0x61626364, 0x80ff0102, 0, 0, 0x7a);
         Judged.due("byte 0", y.change(0, 0), 0x61);

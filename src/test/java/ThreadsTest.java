@@ -243,6 +243,34 @@ public final class ThreadsTest {
         meets("null; A: new T; virtual void Thread.start(); pop; return; B: pop; H: pop; return; catch Throwable A B H;", "000" + "11-11");
         meets("new T; A: virtual void Thread.start(); B: return; H: pop; return; catch Throwable A B H;", "00111");
         meets("new T; dup; A: push 1; pop; B: virtual void Thread.start(); pop; return; H: pop; return; catch Throwable A B H;", "00000" + "1100");
+        // of a receiver that may be two, the one that is hooked later: what starts the other one does not start it
+        ThreadJudge x = of(Judged.main("class T extends Thread { method void run() { return; } } class U extends Thread { method void start() { return; } method void run() { return; } } ", "new T; store 1; new U; store 2; push 1; ifeq L; load 1; goto M; L: load 2; M: virtual void Thread.start(); push 5; pop; load 2; call void Runtime.hook(Thread); return;"));
+        // T.run 14, U.start 15, U.run 16, main 17 .. : start 26, push 27, pop 28, load 29, hook 30, return 31
+        for (int i = 17; i < 32; i++) {
+            Judged.due("T and " + i, x.parallel(i, 14), i > 26 ? 1 : 0);
+            Judged.due("U and " + i, x.parallel(i, 16), i > 30 ? 1 : 0);
+        }
+        // each thread by what starts it alone
+        String tu = "class T extends Thread { method void run() { return; } } class U extends Thread { method void run() { return; } } ";
+        for (int far = 0; far < 40; far += 13) {
+            String fill = "push 1; pop; ".repeat(far);
+            x = of(Judged.main(tu, "new T; store 1; new U; store 2; load 2; virtual void Thread.start(); " + fill + "load 1; virtual void Thread.start(); push 1; pop; return;"));
+            int start = 16 + 5;
+            int later = start + far * 2 + 2;
+            for (int i = 16; i < x.count(6); i++) {
+                Judged.due("T and " + i + " of " + far, x.parallel(i, 14), i > later ? 1 : 0);
+                Judged.due("U and " + i + " of " + far, x.parallel(i, 15), i > start ? 1 : 0);
+            }
+            x = of(Judged.main(tu, "new T; store 1; new U; store 2; load 2; virtual void Thread.start(); load 1; virtual void Thread.start(); load 1; virtual void Thread.join(); " + fill + "load 2; virtual void Thread.join(); push 1; pop; return;"));
+            int join = 16 + 9;
+            int last = join + far * 2 + 2;
+            for (int i = 16; i < x.count(6); i++) {
+                Judged.due("T and " + i + ", joined, of " + far, x.parallel(i, 14), i > 23 && i <= join ? 1 : 0);
+                Judged.due("U and " + i + ", joined, of " + far, x.parallel(i, 15), i > 21 && i <= last ? 1 : 0);
+            }
+        }
+        // two that start it, of which the first one leads to an end
+        meets("new T; store 1; push 1; ifeq L; load 1; virtual void Thread.start(); push 1; pop; return; L: push 1; pop; load 1; virtual void Thread.start(); push 1; return;", "00000011" + "1" + "0000" + "11");
         // threads that are not started are met by none
         meets("new T; pop; return;", "000");
     }
@@ -258,6 +286,16 @@ public final class ThreadsTest {
         meets("new T; virtual void Thread.start(); return; call void Main.main();", "001-");
         meets("push 1; ifeq L; call void Main.main(); L: new T; virtual void Thread.start(); return;", "111111");
         meets("new T; virtual void Thread.start(); push 1; ifeq L; call void Main.main(); L: return;", "111111");
+        // nor is the BEGINNING before it
+        ThreadJudge x = of("class T extends Thread { method void run() { call void Main.main(); return; } } class Main { static method void <clinit>() { push 1; pop; new T; virtual void Thread.start(); return; } static method void main() { return; } }");
+        Judged.due("MAIN is called", x.reached(19, 1), 0);
+        for (int i = 16; i < 21; i++) {
+            Judged.due("the beginning with run " + i, x.parallel(i, 14), 1);
+        }
+        x = of("class T extends Thread { method void run() { call void Main.main(); return; } } class S { static method void <clinit>() { push 1; pop; return; } } class Main extends S { static method void main() { push 1; ifeq L; new T; virtual void Thread.start(); L: return; } }");
+        Judged.due("S's beginning too", x.parallel(16, 14), 1);
+        x = of("class T extends Thread { method void run() { return; } } class S { static method void <clinit>() { push 1; pop; return; } } class Main extends S { static method void main() { push 1; ifeq L; new T; virtual void Thread.start(); L: return; } }");
+        Judged.due("if MAIN is once it is", x.parallel(16, 14), 0);
     }
 
     /** "and the BEGINNING, if a <clinit> of MAIN's class, or of what that extends, is it or calls it so" .. "(to the BEGINNING none does)" .. "(the BEGINNING never)" */
@@ -364,6 +402,12 @@ public final class ThreadsTest {
         meets("new T; store 1; push 1; ifeq L; load 1; virtual void Thread.start(); load 1; virtual void Thread.join(); push 1; pop; return; L: return;", "000000" + "110000");
         // joins on both ways: neither alone is on every way to what is behind both
         meets(start + "push 1; ifeq L; load 1; virtual void Thread.join(); goto M; L: load 1; virtual void Thread.join(); M: return;", "0000" + "111101" + "11".substring(0, 2));
+        // a way by a catch around the very first instructions, ahead of q
+        ThreadJudge x = of(T + "class Main { static field T t; static method void <clinit>() { new T; putstatic Main.t; return; } static method void main() { A: getstatic Main.t; B: virtual void Thread.start(); J: getstatic Main.t; virtual void Thread.join(); push 1; pop; return; H: pop; goto J; catch Throwable A B H; } }");
+        int first = x.method(x.count(5) - 1, 3);
+        meets(x, first, "around the start", "0011111" + "00");
+        x = of(T + "class Main { static field T t; static method void <clinit>() { new T; putstatic Main.t; return; } static method void main() { getstatic Main.t; A: virtual void Thread.start(); B: getstatic Main.t; virtual void Thread.join(); push 1; pop; return; } }");
+        meets(x, x.method(x.count(5) - 1, 3), "no way around the start", "0011000");
         // a way by a catch that goes round the join
         meets(start + "A: push 1; pop; B: load 1; virtual void Thread.join(); H2: push 1; pop; return; H: pop; return; catch Throwable A B H;", "0000" + "1111" + "00011");
     }
@@ -394,6 +438,15 @@ public final class ThreadsTest {
         x = of(Judged.main(t, "call void W.w(); new T; virtual void Thread.start(); call void W.w(); return;"));
         Judged.due("w of main with w of T", x.parallel(17, 17), 1);
         Judged.due("w of main with T", x.parallel(17, 14), 1);
+        // one that both run, one that the first alone runs
+        x = of(Judged.main("class T extends Thread { method void run() { call void W.m(); call void W.n(); return; } } class U extends Thread { method void run() { call void W.m(); return; } } class W { static method void m() { return; } static method void n() { return; } } ", "new T; virtual void Thread.start(); new U; virtual void Thread.start(); return;"));
+        // T.run 14 .. 16, U.run 17, 18, m 19, n 20
+        Judged.due("m with n", x.parallel(19, 20), 1);
+        Judged.due("n with m", x.parallel(20, 19), 1);
+        Judged.due("n with n", x.parallel(20, 20), 0);
+        Judged.due("m with m", x.parallel(19, 19), 1);
+        Judged.due("n with U", x.parallel(20, 17), 1);
+        Judged.due("n with T", x.parallel(20, 14), 0);
         // with thread 0 it does not matter whether the other one is single
         x = of(Judged.main(t, "L: new U; virtual void Thread.start(); push 1; ifeq L; return;"));
         Judged.due("main in the loop", x.parallel(x.count(6) - 4, 16), 1);
