@@ -248,6 +248,20 @@ public final class LateTest {
                 Judged.due("surely in a alone", x.held(x.method(m, 3), true, -1), text.charAt(m - 17) == 'a' ? 1 : 0);
             }
         }
+        // of two that are called, the one that is there last has it already
+        String k = "class K { static method void z() { return; } static method void x(A) { load 0; virtual void A.m(); return; } static method void a(A) { load 0; call void K.x(A); return; } } class A { method void m() { call void K.z(); return; } } class B extends A { method void m() { return; } } ";
+        for (String direct : new String[] {"load 2; virtual void A.m(); ", "load 1; virtual void A.m(); ", ""}) {
+            ThreadJudge x = of(k + Judged.main("", "call void K.z(); new A; store 1; new B; store 2; load 1; virtual void A.m(); load 2; virtual void A.m(); load 1; call void K.x(A); load 2; call void K.x(A); string \"s\"; enter; " + direct + "load 1; call void K.a(A); load 2; call void K.a(A); null; exit; return;"));
+            for (int m = 17; m < 22; m++) {
+                Judged.due("may be held in " + m, x.held(x.method(m, 3), false, -1), 1);
+            }
+        }
+        // of two that begin likewise
+        k = "class K { static method void z() { return; } static method void x() { getstatic C.f; pop; return; } static method void a() { call void K.x(); return; } } class C extends S { static field int f; static method void <clinit>() { call void K.z(); return; } } class S { static field int g; static method void <clinit>() { return; } } ";
+        ThreadJudge x = of(k + Judged.main("", "call void K.z(); getstatic S.g; pop; getstatic C.f; pop; call void K.x(); string \"s\"; enter; getstatic S.g; pop; call void K.a(); null; exit; return;"));
+        for (int m = 17; m < 22; m++) {
+            Judged.due("may be held in " + m, x.held(x.method(m, 3), false, -1), 1);
+        }
     }
 
     private static void runLate() {

@@ -306,6 +306,14 @@ public final class ManyTest {
         x.run(2000, 1);
         Judged.due("clashes", x.count(21), 2);
         Judged.due("lesser", x.clash(0, 0), run);
+        // of an object behind many others
+        String makes = times("new Object; pop; ", 59);
+        for (int many = 0; many < 2; many++) {
+            String other = many == 0 ? "getstatic Main.k" : "new K";
+            x = of(0, "class K { field int n; } class M { static method void m() { " + makes + "return; } } class T extends Thread { method void run() { getstatic Main.k; push 1; put K.n; return; } } class Main { static field K k; static method void main() { call void M.m(); " + times("new Object; pop; ", 30) + "new K; putstatic Main.k; new T; virtual void Thread.start(); " + other + "; push 1; put K.n; return; } }");
+            Judged.due("objects", x.count(9), 59 + 30 + 2 + 2 + many);
+            Judged.due("of one object, or of two", x.count(12), 1 - many);
+        }
         // each with each: 30 writings in two threads
         x = of(0, "class T extends Thread { method void run() { " + times("push 1; putstatic Main.n; ", 30) + "return; } } class Main { static field int n; static method void main() { new T; virtual void Thread.start(); new T; virtual void Thread.start(); return; } }");
         Judged.due("each with each", x.count(12), 30 * 31 / 2);

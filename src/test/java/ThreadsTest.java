@@ -761,6 +761,14 @@ public final class ThreadsTest {
         Judged.due("with itself", x.knot(0, 1) * 10 + x.knot(0, 2), 11);
         x = of(k.replace("@", "new Object; putstatic Main.a; push 1; ifeq L; new Object; putstatic Main.a; L:"));
         Judged.due("two singular ones", x.count(13), 2);
+        // of what is wanted only that which leads back
+        x = of(AB + "getstatic Main.a; push 1; ifeq L; getstatic Main.b; goto M; L: getstatic Main.c; M: call void Main.go(Object, Object); call void Main.ba(); return; } }");
+        Judged.due("b leads back, c does not", x.count(13), 2);
+        Judged.due("a, b", x.knot(0, 1) * 10 + x.knot(0, 2), 1);
+        Judged.due("b, a", x.knot(1, 1) * 10 + x.knot(1, 2), 10);
+        x = of(AB + "getstatic Main.a; push 1; ifeq L; getstatic Main.b; goto M; L: getstatic Main.c; M: call void Main.go(Object, Object); call void Main.ca(); return; } }");
+        Judged.due("c leads back, b does not", x.count(13), 2);
+        Judged.due("a, c", x.knot(0, 1) * 10 + x.knot(0, 2), 2);
         // a row by way of itself is no knot, if it is singular
         x = of(AB + "getstatic Main.a; getstatic Main.a; call void Main.go(Object, Object); getstatic Main.a; getstatic Main.b; call void Main.go(Object, Object); return; } }");
         Judged.due("a and a, a and b", x.count(13), 0);
