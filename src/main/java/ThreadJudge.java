@@ -4290,16 +4290,13 @@ public final class ThreadJudge {
                 && p.callee(i, flow.obj[Flow.O_SITE][o]) == WAIT;
         }
 
+        /** What each object leads to. (Whether it leads to itself is asked by none: a singular one does not.) */
         private void fillChains() {
             Arrays.fill(chains, 0, flow.objects * WORDS, 0L);
             for (int node = 0; node < flow.nodes; node++) {
                 for (int o = 0; meet(wanted, node * WORDS, wanted, node * WORDS, WORDS) && o < flow.objects; o++) {
                     if (hasBit(may, node * WORDS, o)) {
-                        boolean was = hasBit(chains, o * WORDS, o);
                         merge(chains, o * WORDS, wanted, node * WORDS, WORDS);
-                        if (!was && hasBit(t.singular, 0, o)) {
-                            dropBit(chains, o * WORDS, o);
-                        }
                     }
                 }
             }
