@@ -6,7 +6,7 @@ public final class AgainTest {
     private static final String T = "class T extends Thread implements Runnable { field T t; field Object o; static field T s; field T[] r; synchronized method void run() { load 0; get T.t; ifnull L; load 0; get T.t; enter; load 0; get T.t; store 1; load 1; putstatic T.s; null; exit; L: new State; throw; } method void uncaught(Throwable) { load 0; load 1; put T.o; return; } static method void <clinit>() { new T; putstatic T.s; return; } } ";
     private static final String[] TEXTS = {
         T + "class U extends T { method void run() { load 0; special void T.run(); return; } method Object got() { load 0; get T.o; give; } } "
-            + Judged.main("", "new T; store 1; new U; store 2; load 1; load 2; put T.t; load 2; load 1; put T.t; load 1; virtual void Thread.start(); load 2; virtual void Thread.start(); load 1; enter; L: load 1; virtual void Object.wait(); push 1; ifeq L; null; exit; load 1; virtual void Thread.join(); load 2; virtual void Thread.run(); load 2; cast U; virtual Object U.got(); pop; return;"),
+            + Judged.main("", "new T; store 1; new U; store 2; load 1; load 2; put T.t; load 2; load 1; put T.t; load 1; virtual void Thread.start(); load 2; virtual void Thread.start(); load 2; virtual void Object.wait(); load 1; enter; L: load 1; virtual void Object.wait(); push 1; ifeq L; null; exit; load 1; virtual void Thread.join(); load 2; virtual void Thread.run(); load 2; cast U; virtual Object U.got(); pop; return;"),
         "interface F { abstract method Object f(Object); } class K { static field Object s; field Object o; static method Object k(Object, Object) { load 1; putstatic K.s; load 0; give; } method Object m() { load 0; get K.o; give; } method void <init>() { load 0; string \"x\"; put K.o; return; } } "
             + Judged.main("class H extends Thread { method void run() { getstatic K.s; cast K; store 1; load 1; load 0; put K.o; load 1; get K.o; pop; return; } } ", "A: new K; lambda F Object K.k(Object, Object); new K; dup; special void K.<init>(); virtual Object F.f(Object); pop; string \"K\"; call Class Class.named(String); dup; virtual Object Class.newInstance(); store 1; string \"m\"; virtual Method Class.find(String); load 1; virtual Object Method.invoke(Object); store 2; new H; call void Runtime.hook(Thread); push 2; array Object; dup; push 0; load 2; setelement; push 0; element; pop; B: getstatic K.s; cast K; push 1; pop; string \"y\"; put K.o; return; E: putstatic K.s; return; catch Cast A B E;"),
         "excluded class X extends Thread { static field Object f; method void run() { return; } static method void x() { return; } static method void <clinit>() { return; } } class S { static field int n; static field Object l; static method void w(Object) { load 0; enter; getstatic S.n; push 1; add; putstatic S.n; null; exit; return; } static method void v(Object) { load 0; call void S.w(Object); return; } } class R extends Thread { method void run() { load 0; call void S.v(Object); string \"l\"; call void S.w(Object); return; } } "
@@ -29,7 +29,72 @@ public final class AgainTest {
                 Judged.due("text " + of + " by " + policy + " behind all that are granted too few", first(asked, answers(asked, TEXTS[of], policy, TEXTS[of], 3 + 4), due), -1);
             }
         }
+        runs();
+        hooksAgain();
         Judged.end();
+    }
+
+    /** Runs anew, behind others of the same object: all that may be told. */
+    private static void runs() {
+        for (String text : TEXTS) {
+            List<List<Integer>> due = new ArrayList<>();
+            for (int draw = 0; draw < 6; draw++) {
+                due.add(ran(Judged.loaded(text), draw));
+            }
+            for (int draw = 0; draw < 6; draw++) {
+                ThreadJudge x = Judged.loaded(text);
+                x.begin();
+                x.run(15 + draw * 20, draw * 5 + 3);
+                Judged.yes("run " + draw + " behind another one of " + text, ran(x, draw).equals(due.get(draw)));
+            }
+        }
+    }
+
+    private static List<Integer> ran(ThreadJudge x, int draw) {
+        List<Integer> all = new ArrayList<>();
+        x.begin();
+        for (int part = 0; part < 6; part++) {
+            all.add(x.run(14, draw + part));
+            for (int t = 0; t < x.count(19); t++) {
+                for (int what = 0; what < 5; what++) {
+                    all.add(x.state(t, what));
+                }
+                for (int place = 0; place < 3; place++) {
+                    all.add(x.local(t, place));
+                }
+            }
+            for (int what = 17; what < 25; what++) {
+                all.add(x.count(what));
+            }
+        }
+        for (int n = 0; n < Math.min(12, x.count(18)); n++) {
+            for (int what = 1; what < 5; what++) {
+                all.add(x.thing(n, what));
+            }
+            all.add(x.value(n, 2));
+        }
+        for (int k = 0; k < 4; k++) {
+            all.add(x.clash(k, 0));
+            all.add(x.clash(k, 1));
+        }
+        return all;
+    }
+
+    /** What was noted in a run that ended before is not noted in the next one. */
+    private static void hooksAgain() {
+        ThreadJudge x = Judged.loaded("class T extends Thread { static volatile field int n; method void run() { push 1; putstatic T.n; return; } } class U extends Thread { method void run() { return; } } " + Judged.main("", "new U; new T; virtual void Thread.start(); getstatic T.n; ifne L; pop; return; L: call void Runtime.hook(Thread); push 5; pop; return;"));
+        x.begin();
+        for (int t : new int[] {0, 0, 0, 1, 1, 0, 0, 0}) {
+            Judged.due("step", x.step(t), 1);
+        }
+        Judged.due("noted, not begun", x.count(19), 2);
+        x.begin();
+        for (int t : new int[] {0, 0, 0, 0, 0, 0, 0, 1, 1, 1}) {
+            Judged.due("step", x.step(t), 1);
+        }
+        Judged.due("all are ended", x.state(0, 0) * 10 + x.state(1, 0), 44);
+        Judged.due("none was noted", x.count(19), 2);
+        Judged.due("none goes on", x.run(10, 1), 0);
     }
 
     /** The first answer that is not as due; - 1 without. */

@@ -251,6 +251,15 @@ public final class AnswersTest {
         wrong("(A) @A");
         wrong("(A)@.a");
         wrong("callers @A");
+        // these words come before classes of such names
+        ThreadJudge named = Judged.loaded(Judged.main("class callers { } class into { method void m() { return; } } class all { method void n() { return; } } ", "return;"));
+        named.analyse(0, 300);
+        Judged.due("callers alone", Judged.ask(named, "callers"), -1 - 7);
+        Judged.due("callers and a name", Judged.ask(named, "callers Main"), -1 - 8);
+        Judged.due("callers and a full stop", Judged.ask(named, "callers.m"), -1 - 7);
+        Judged.due("into and a sign", Judged.ask(named, "into | Main"), -1 - 5);
+        Judged.due("all and a full stop", Judged.ask(named, "all.n"), -1 - 3);
+        Judged.due("all", Judged.ask(named, "all"), 20);
         wrong("callers(@)");
         wrong("callers @callers(A)");
         wrong("into(A)@(B)");

@@ -9,6 +9,8 @@ public final class ClocksTest {
         oneWrites();
         onePlace();
         finalAndVolatile();
+        finalOfThings();
+        pairsBesideOthers();
         entersBehindExit();
         locksToo();
         waitingToo();
@@ -32,6 +34,7 @@ public final class ClocksTest {
         deadlockOfThree();
         noRing();
         ringsAreCountedOnce();
+        ringsStay();
         ringOfLocks();
         ringBehindWait();
         foreseen();
@@ -129,6 +132,40 @@ public final class ClocksTest {
         mainFirst(0, "", "push 1; putstatic Main.v;", head + "push 1; putstatic Main.v;");
         mainFirst(0, "", "getstatic Main.k; push 1; put K.v;", head + "getstatic Main.k; push 1; put K.v;");
         mainFirst(0, "static final field int f; static method void <clinit>() { new T; virtual void Thread.start(); push 1; putstatic Main.f; return; } ", "getstatic Main.f; pop;", "");
+    }
+
+    /** "neither final .." of a thing that is shared before its field is written; and of another run on the same object */
+    private static void finalOfThings() {
+        String init = "class F { final field int f; field int n; method void <init>() { load 0; putstatic F.s; load 0; push 1; put F.f; load 0; push 1; put F.n; return; } static volatile field F s; volatile field int v; } ";
+        ThreadJudge x = Judged.loaded(init + "class T extends Thread { method void run() { getstatic F.s; get F.v; pop; getstatic F.s; get F.f; pop; getstatic F.s; get F.n; pop; return; } } " + Judged.main("", START + "new F; special void F.<init>(); return;"));
+        for (int turn = 0; turn < 3; turn++) {
+            x.begin();
+            steps(x, 0, 2 + 1 + 1 + 2);
+            all(x, 1);
+            all(x, 0);
+            Judged.due("n alone, run " + turn, x.count(21), 1);
+            Judged.due("its writing", x.clash(0, 0), x.method(17, 3) + 7);
+            x.begin();
+            steps(x, 0, 2 + 1 + 1 + 2);
+            all(x, 0);
+            all(x, 1);
+            Judged.due("written first, run " + turn, x.count(21), 1);
+            x.begin();
+            all(x, 0);
+            steps(x, 1, 1);
+            Judged.due("not yet", x.count(21), 0);
+        }
+    }
+
+    /** Pairs of instructions that stand far from each other, and of those beside them, are not taken for one another. */
+    private static void pairsBesideOthers() {
+        ThreadJudge x = Judged.loaded("class Main { static field int a; static field int b; static method void main() { " + START + "getstatic Main.a; getstatic Main.b; pop; pop; return; } } class T extends Thread { method void run() { push 1; putstatic Main.b; " + "push 1; pop; ".repeat(31) + "push 1; putstatic Main.a; return; } } ");
+        x.begin();
+        all(x, 0);
+        all(x, 1);
+        Judged.due("a with a, b with b", x.count(21), 2);
+        Judged.due("b's came first", x.clash(0, 0) * 1000 + x.clash(0, 1), 17022);
+        Judged.due("then a's", x.clash(1, 0) * 1000 + x.clash(1, 1), 16086);
     }
 
     /** "entering behind exiting .. of the same thing" */
@@ -505,6 +542,40 @@ public final class ClocksTest {
         Judged.due("main waits for the first's", x.state(0, 0), 1);
         Judged.due("nothing goes on", x.run(10, 1), 0);
         Judged.due("two", x.count(22), 2);
+    }
+
+    /** Rings of threads that are not beside each other, while others go on. */
+    private static void ringsStay() {
+        String t = "class T extends Thread { field Object a; field Object b; method void run() { load 0; get T.a; enter; load 0; get T.b; enter; null; exit; null; exit; return; } } class U extends Thread { method void run() { L: goto L; } } ";
+        String make = "new T; store 1; load 1; string \"@\"; put T.a; load 1; string \"#\"; put T.b; load 1; virtual void Thread.start(); ";
+        String u = "new U; virtual void Thread.start(); ";
+        // threads 1 and 3, 4 and 6; 2 and 5 go on
+        ThreadJudge x = Judged.loaded(Judged.main(t, make.replace("@", "a").replace("#", "b") + u + make.replace("@", "b").replace("#", "a") + make.replace("@", "c").replace("#", "d") + u + make.replace("@", "d").replace("#", "c") + "L: goto L;"));
+        x.begin();
+        steps(x, 0, 10 * 4 + 2 * 2);
+        for (int k : new int[] {1, 3, 4, 6}) {
+            steps(x, k, 3);
+        }
+        int[] order = {1, 3, 4, 6};
+        int[] due = {0, 1, 1, 2};
+        for (int k = 0; k < 4; k++) {
+            steps(x, order[k], 2);
+            for (int more = 0; more < 5; more++) {
+                Judged.due("rings behind thread " + order[k], x.count(22), due[k]);
+                steps(x, more % 2 == 0 ? 2 : 5, 1);
+                steps(x, 0, 1);
+            }
+        }
+        Judged.due("no more", x.count(22), 2);
+        // main and thread 2
+        x = Judged.loaded(Judged.main(t, u + make.replace("@", "a").replace("#", "b") + "string \"b\"; enter; string \"a\"; enter; null; exit; null; exit; return;"));
+        x.begin();
+        steps(x, 0, 2 + 10 + 3);
+        steps(x, 2, 5);
+        for (int more = 0; more < 5; more++) {
+            Judged.due("a ring of 0 and 2", x.count(22), 1);
+            steps(x, 1, 1);
+        }
     }
 
     private static void ringOfLocks() {

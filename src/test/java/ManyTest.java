@@ -118,6 +118,14 @@ public final class ManyTest {
             Judged.due("calls", x.calls(x.method(115, 3) + k, false, 0), 17 + 2 * k);
             Judged.due("once", x.reached(18 + 2 * k, 1), 1);
         }
+        // brackets, of which what comes last is not all
+        Judged.due("with a lesser one behind", Judged.ask(x, "(A.b48 | Object.wait)"), 2);
+        Judged.due("lesser", x.answered(0), 1);
+        Judged.due("greater", x.answered(1), 114);
+        Judged.due("callers of both", Judged.ask(x, "callers(A.b48 | A.b0)"), 2);
+        Judged.due("into", Judged.ask(x, "into(A.b48 | A.b0 | String) - main"), 4);
+        Judged.due("of it", Judged.ask(x, "(A.b48 | A.a48) & (A.a48 | Object)"), 1);
+        Judged.due("that", x.answered(0), 113);
         // one instruction that calls many
         text = times("class K# extends K { method void m() { return; } } ", 18) + "class K { method void m() { return; } static field K k; } " + "class L { " + times("static method void x#() { return; } ", 60) + "} class Main { static method void main() { " + times("new K#; putstatic K.k; ", 18) + "getstatic K.k; virtual void K.m(); return; } }";
         x = of(0, text);

@@ -15,6 +15,8 @@ public final class NativesTest {
         theFirstThing();
         targetOfThread();
         foundInItsClassAlone();
+        lambdaOfMany();
+        hooksByContexts();
         Judged.end();
     }
 
@@ -222,6 +224,59 @@ public final class NativesTest {
         x = of(Judged.main(k, "new Object; pop; new Thread; dup; new T; put Thread.target; dup; new Thread; special void Thread.<init>(Runnable); pop; return;"));
         same("of another one", x.object(1, 0) + " " + x.field(1, 0, -1) + " " + x.field(1, 0, 0) + " " + x.field(1, 0, 1), "17 2 2 3");
         Judged.due("of no Thread none", x.field(0, 0, -1), 0);
+    }
+
+    /** "a call of its method m, with what it HAS and then the values" */
+    private static void lambdaOfMany() {
+        String f = "interface F { abstract method int f(int, Object); } class K { static method int k(int, Object, int, Object, int, Object) { load 0;" + P + "load 1; is A;" + P + "load 2;" + P + "load 3; is B;" + P + "load 4;" + P + "load 5; is K;" + P + "push 6; give; } } ";
+        ThreadJudge x = of(Judged.main(A + f, "push 99; push 98; push 97; push 96; push 95; push 94; pop; pop; pop; pop; pop; pop; push 11; new A; push 12; new B; lambda F int K.k(int, Object, int, Object, int, Object); push 13; new K; virtual int F.f(int, Object);" + P + "return;"));
+        x.begin();
+        for (int k = 0; k < 20; k++) {
+            Judged.due("step " + k, x.step(0), 1);
+        }
+        Judged.due("in k", x.state(0, 3), x.count(5) - 2);
+        int[] locals = {11, 0, 12, 1, 13, 3, 0, 0, 0, 0};
+        for (int k = 0; k < 10; k++) {
+            Judged.due("local " + k, x.local(0, k), locals[k]);
+        }
+        x.run(100, 1);
+        int[] due = {11, 1, 12, 1, 13, 1, 6};
+        for (int k = 0; k < due.length; k++) {
+            Judged.due("said " + k, x.said(k), due[k]);
+        }
+        Judged.due("no more", x.count(20), due.length);
+        Judged.yes("foreseen", x.foreseen());
+        // one that has one, or none: what is not set is 0
+        x = of(Judged.main("interface G { abstract method void g(); } class K { static method void one(int) { return; } static method void none() { return; } } ", "push 99; push 98; push 97; push 96; pop; pop; pop; pop; push 5; lambda G void K.one(int); virtual void G.g(); lambda G void K.none(); virtual void G.g(); return;"));
+        x.begin();
+        for (int k = 0; k < 11; k++) {
+            Judged.due("step " + k, x.step(0), 1);
+        }
+        for (int k = 0; k < 10; k++) {
+            Judged.due("local " + k + " of one", x.local(0, k), k == 0 ? 5 : 0);
+        }
+        for (int k = 0; k < 3; k++) {
+            Judged.due("step", x.step(0), 1);
+        }
+        for (int k = 0; k < 10; k++) {
+            Judged.due("local " + k + " of none", x.local(0, k), 0);
+        }
+    }
+
+    /** "hook: .. an instance with that as receiver (context as if the instruction called it)": each by its own */
+    private static void hooksByContexts() {
+        String t = "class T extends Thread { method void run() { new A; pop; load 0; pop; return; } } ";
+        for (int policy = 0; policy < 4; policy++) {
+            ThreadJudge x = Judged.loaded(Judged.main(A + t, "new T; call void Runtime.hook(Thread); new T; call void Runtime.hook(Thread); new T; call void Runtime.hook(Thread); return;"));
+            x.analyse(policy, 300);
+            Judged.due("instances of run", x.reached(20, 0), policy == 1 || policy == 2 ? 3 : 1);
+            x.begin();
+            for (int k = 0; k < 60 && x.foreseen(); k++) {
+                x.run(1, k);
+            }
+            Judged.yes("foreseen by " + policy, x.foreseen());
+            Judged.due("ended", x.state(3, 0), 4);
+        }
     }
 
     /** "find: .. the first of the class, what it extends, .. that has a method with lines of this name": not of the class that stands behind it */

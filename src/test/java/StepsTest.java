@@ -302,6 +302,19 @@ public final class StepsTest {
         Judged.due("no run", x.run(10, 3), 0);
         Judged.due("frames", x.state(0, 1), 30);
         Judged.due("instruction", x.state(0, 2), 14);
+        // what began in that step has not begun
+        String made = "push 398; store 1; new Object; store 2; L: new Object; pop; inc 1 -1; load 1; ifgt L; ";
+        ThreadJudge y = begun("class R { } class S extends R { } class K extends S { } class M { static synchronized method void s() { return; } } ", made + "push 1; pop; load 2; pop; new Object; pop; new K; pop; return;");
+        y.run(2000, 1);
+        y.run(2000, 1);
+        Judged.due("full", y.count(24), 1);
+        Judged.due("things", y.count(18), 400);
+        Judged.due("Main and Object alone", y.count(23), 2);
+        y = begun("class R { } class S extends R { } class K extends S { static synchronized method void s() { return; } } ", made + "new Object; pop; call void K.s(); return;");
+        y.run(2000, 1);
+        y.run(2000, 1);
+        Judged.due("full", y.count(24), 1);
+        Judged.due("Main and Object alone", y.count(23), 2);
         Judged.yes("begin anew", x.begin());
         Judged.due("not full any more", x.count(24), 0);
         Judged.due("goes on", x.step(0), 1);
@@ -536,6 +549,16 @@ public final class StepsTest {
 
     /** "Comparisons of 22 to 33 are of the second last with the last (or with 0). 34 to 37 of references." */
     private static void comparisons() {
+        // what stood on the stack before is no operand
+        says("", "push 1; push 2; push 3; pop; swap;" + P + P + "return;", 1, 2);
+        says("", "push 1; push 2; push 3; push 4; pop; pop; swap; push 9; pop;" + P + P + "return;", 1, 2);
+        says("", "push 5; push 6; under;" + P + P + P + "return;", 6, 5, 6);
+        says("", "push 5; push 6; dup;" + P + P + P + "return;", 6, 6, 5);
+        says("", "push 5; push 6; pop;" + P + "return;", 5);
+        says("", "push -1; pop; goto L; push 3;" + P + "L: push 4;" + P + "return;", 4);
+        says("", "null; pop; goto L; push 3;" + P + "L: push 4;" + P + "return;", 4);
+        says("", "push -1; push -2; pop; pop; push 0; ifeq L; push 3;" + P + "L: push 4;" + P + "return;", 4);
+        says("", "push 7; push 9; pop; neg;" + P + "return;", -7);
         int[] some = {-2147483648, -1, 0, 1, 2147483647};
         String[] names = {"eq", "ne", "lt", "ge", "gt", "le"};
         for (int how = 0; how < 6; how++) {
@@ -635,6 +658,10 @@ public final class StepsTest {
 
     /** "(before Store: a reference that is not below the elements' class). 47: not null, and not below t: Cast; 48: 1 if not null and below t, else 0." */
     private static void storeCastIs() {
+        // thing 0 is looked at as each other one
+        raises("new B; store 1; push 2; array K; push 0; load 1; setelement;", 10);
+        raises("new C; store 1; push 2; array K; push 0; load 1; setelement;", -1);
+        raises("new B; store 1; load 1; cast K; pop;", 9);
         raises("push 1; array K; push 0; new B; setelement;", 10);
         raises("push 1; array C; push 0; new K; setelement;", 10);
         raises("push 1; array K; push 0; push 1; array K; setelement;", 10);
@@ -742,6 +769,15 @@ public final class StepsTest {
         Judged.due("frames go", x.state(0, 1), 1);
         Judged.due("at H", x.state(0, 2), x.count(6) - 1);
         Judged.due("all have begun, Out, Cast, Throwable too", x.count(23), 9);
+        // a 'catch' of a frame that goes is not looked at; nor is that of what has begun in it
+        String caught = "A: push 1; pop; B: return; H: push 9;" + P + "return; catch Throwable A B H; ";
+        String rest = "class S { static method void <clinit>() { new Cast; throw; } } class K extends S { static method void <clinit>() { " + caught + "} } class L extends K { static method void <clinit>() { " + caught + "} } ";
+        says(rest, "A: new L; pop; B: return; H: is Cast;" + P + "new L; pop; new K; pop; return; catch Throwable A B H;", 1);
+        says(rest.replace("new Cast; throw;", "A: new Cast; throw; B: null; H: new Index; throw; catch Cast A B H;"), "A: new L; pop; B: return; H: is Index;" + P + "return; catch Throwable A B H;", 1);
+        // the one in the middle: what is above it has ended, what is below it goes
+        says("class R { static method void <clinit>() { push 5;" + P + "return; } } class S extends R { static method void <clinit>() { new Cast; throw; } } class K extends S { static method void <clinit>() { " + caught + "} } ", "A: new K; pop; B: return; H: is Cast;" + P + "return; catch Throwable A B H;", 5, 1);
+        // a call by where such a frame stood goes as any other
+        says("class S { static method void <clinit>() { return; } } class K extends S { static method void <clinit>() { return; } static field int f; } class M { static method void a() { A: call void M.b(); B: return; H: is Cast;" + P + "return; catch Throwable A B H; } static method void b() { new Cast; throw; } } ", "A: getstatic K.f; pop; call void M.a(); push 6;" + P + "B: return; H: push 9;" + P + "return; catch Throwable A B H;", 1, 6);
         // those that began by another instruction stay
         x = begun("class S { static method void <clinit>() { A: new K; pop; B: return; H: return; catch Cast A B H; } } class K { static method void <clinit>() { new Cast; throw; } } ", "new S; return;");
         steps(x, 0, 1 + 1 + 2);
@@ -1016,6 +1052,19 @@ public final class StepsTest {
             }
         }
         steps(x, 0, 2);
+        // thread 0 sleeps longest, or last
+        for (int first = 0; first < 2; first++) {
+            x = fields("class T extends Thread { method void run() { getstatic Main.o; enter; getstatic Main.o; virtual void Object.wait(); getstatic Main.o; exit; return; } } class U extends Thread { method void run() { getstatic Main.o; enter; " + notify + notify + "getstatic Main.o; exit; return; } } ", "static field Object o;",
+                "new Object; putstatic Main.o; new T; virtual void Thread.start(); new U; virtual void Thread.start(); getstatic Main.o; enter; getstatic Main.o; virtual void Object.wait(); getstatic Main.o; exit; return;");
+            steps(x, 0, 6);
+            steps(x, first, 4);
+            steps(x, 1 - first, 4);
+            steps(x, 2, 4);
+            Judged.due("the first is told", x.state(first, 0), 1);
+            Judged.due("the other one sleeps", x.state(1 - first, 0), 2);
+            steps(x, 2, 2);
+            Judged.due("then the other", x.state(1 - first, 0), 1);
+        }
         x = fields(text, "static field Object o;", starts + notify.replace("notify", "notifyAll") + "getstatic Main.o; exit; return;");
         steps(x, 0, 8);
         for (int t : new int[] {3, 1}) {
@@ -1118,6 +1167,11 @@ public final class StepsTest {
             Judged.due("steps", x.count(17), 3 + n * 5);
             Judged.due("nothing goes on", x.run(100, 1), n == 11 ? 11 : 0);
         }
+        // one that is noted again does not count anew
+        ThreadJudge y = begun("class T extends Thread { method void run() { return; } } ", "push 11; store 1; L: new T; dup; call void Runtime.hook(Thread); dup; call void Runtime.hook(Thread); dup; store 2; call void Runtime.hook(Thread); inc 1 -1; load 1; ifgt L; load 2; call void Runtime.hook(Thread); return;");
+        y.run(2000, 1);
+        Judged.due("eleven and main", y.count(19), 12);
+        Judged.due("not full", y.count(24), 0);
         // those that were started do not count
         ThreadJudge x = begun("class T extends Thread { method void run() { return; } } ", "push 6; store 1; L: new T; dup; call void Runtime.hook(Thread); virtual void Thread.start(); inc 1 -1; load 1; ifgt L; push 5; store 1; M: new T; call void Runtime.hook(Thread); inc 1 -1; load 1; ifgt M; return;");
         x.run(2000, 1);

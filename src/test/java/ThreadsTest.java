@@ -814,6 +814,11 @@ public final class ThreadsTest {
         Judged.due("loose in one of two", x.count(14), 1);
         Judged.due("instruction", x.waits(0, 0), 15);
         Judged.due("loose", x.waits(0, 1), 1);
+        x = of(1, Judged.main("class K { static method void w(Object) { L: load 0; virtual void Object.wait(); goto L; } } ", "string \"a\"; call void K.w(Object); string \"a\"; enter; string \"a\"; call void K.w(Object); null; exit; return;"));
+        Judged.due("loose in the first of two", x.waits(0, 1), 1);
+        x = of(1, Judged.main("class K { static method void w(Object) { L: load 0; virtual void Object.wait(); goto L; } } ", "string \"a\"; enter; string \"a\"; call void K.w(Object); string \"a\"; call void K.w(Object); null; exit; return;"));
+        Judged.due("in none of two", x.count(14), 0);
+        x = of(1, Judged.main("class K { static method void w(Object) { L: load 0; virtual void Object.wait(); goto L; } } ", "string \"a\"; enter; string \"a\"; call void K.w(Object); null; exit; string \"a\"; call void K.w(Object); return;"));
         Judged.due("no what", x.waits(0, 2), -1);
         Judged.due("no what", x.waits(0, -1), -1);
         Judged.due("none", x.waits(-1, 0), -1);
