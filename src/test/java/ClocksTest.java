@@ -10,6 +10,7 @@ public final class ClocksTest {
         onePlace();
         finalAndVolatile();
         finalOfThings();
+        volatilesAnew();
         pairsBesideOthers();
         entersBehindExit();
         locksToo();
@@ -154,6 +155,20 @@ public final class ClocksTest {
             all(x, 0);
             steps(x, 1, 1);
             Judged.due("not yet", x.count(21), 0);
+        }
+    }
+
+    /** What was written and read in another run of the same object is not before anything. */
+    private static void volatilesAnew() {
+        ThreadJudge x = Judged.loaded("class F { volatile field int v; field int n; static volatile field F s; static field int m; } class T extends Thread { method void run() { push 1; putstatic F.m; return; } } class U extends Thread { method void run() { getstatic F.s; get F.v; pop; getstatic F.m; pop; return; } } "
+            + Judged.main("", "new F; putstatic F.s; new T; virtual void Thread.start(); new U; virtual void Thread.start(); getstatic F.s; push 2; put F.v; return;"));
+        for (int turn = 0; turn < 4; turn++) {
+            x.begin();
+            steps(x, 0, 6);
+            all(x, 1);
+            all(x, 2);
+            Judged.due("m, run " + turn, x.count(21), 1);
+            all(x, 0);
         }
     }
 

@@ -318,7 +318,7 @@ public final class ManyTest {
         String makes = times("new Object; pop; ", 59);
         for (int many = 0; many < 2; many++) {
             String other = many == 0 ? "getstatic Main.k" : "new K";
-            x = of(0, "class K { field int n; } class M { static method void m() { " + makes + "return; } } class T extends Thread { method void run() { getstatic Main.k; push 1; put K.n; return; } } class Main { static field K k; static method void main() { call void M.m(); " + times("new Object; pop; ", 30) + "new K; putstatic Main.k; new T; virtual void Thread.start(); " + other + "; push 1; put K.n; return; } }");
+            x = of(0, "class K { field int n; } class M { static method void m() { " + makes + "call void M.l(); return; } static method void l() { new K; putstatic Main.k; return; } } class T extends Thread { method void run() { getstatic Main.k; push 1; put K.n; return; } } class Main { static field K k; static method void main() { call void M.m(); " + times("new Object; pop; ", 30) + "new T; virtual void Thread.start(); " + other + "; push 1; put K.n; return; } }");
             Judged.due("objects", x.count(9), 59 + 30 + 2 + 2 + many);
             Judged.due("of one object, or of two", x.count(12), 1 - many);
         }

@@ -494,6 +494,17 @@ public final class StepsTest {
         Judged.due("ended", x.state(0, 0), 4);
         Judged.due("no frames", x.state(0, 1), 0);
         Judged.due("all have begun, Cast and Throwable too", x.count(23), 5);
+        String caught = "A: push 1; pop; B: return; H: push 9;" + P + "return; catch Throwable A B H; ";
+        for (String text : new String[] {"class S { static method void <clinit>() { new Cast; throw; } } class Main extends S { static method void <clinit>() { " + caught + "} static method void main() { " + caught + "} }",
+            "class S { static method void <clinit>() { return; } } class Main extends S { static method void <clinit>() { new Cast; throw; } static method void main() { " + caught + "} }",
+            "class S { static method void <clinit>() { new Cast; throw; } } class Main extends S { static method void main() { " + caught + "} }"}) {
+            x = begun(text);
+            x.run(50, 1);
+            Judged.due("nothing is caught", x.count(20), 0);
+            Judged.due("ended", x.state(0, 0), 4);
+            Judged.due("no frames", x.state(0, 1), 0);
+            Judged.due("no instruction of main is done", x.count(17), text.contains("{ return; }") ? 3 : 2);
+        }
         x = begun("class Main { static method void <clinit>() { return; } static synchronized method void main() { return; } }");
         Judged.due("the LOCK is not entered yet", x.count(18), 0);
         steps(x, 0, 1);
