@@ -552,6 +552,12 @@ public final class LinksTest {
         line("@lambda I void A.q(); pop;");
         line("@lambda I int A.t(); pop;");
         fineLine("null; virtual void B.m(); null; push 1; virtual int B.g(int); pop; call void B.t(); null; virtual void I.notify(); null; virtual void Abs.a();");
+        // nor what an interface has that the class is not below
+        String beside = "interface P { method void p() { return; } static method void s() { return; } } class A implements Q { } interface Q { method void q() { return; } } interface R { method void r() { return; } static method void t() { return; } } ";
+        for (String op : new String[] {"null; @virtual void A.p();", "null; @virtual void A.r();", "@call void A.s();", "@call void A.t();", "null; @special void A.r();", "@lambda Runnable void A.s(); pop;", "null; @virtual void Q.r();", "null; @virtual void Q.p();"}) {
+            Judged.fault(12, Judged.main(beside, op + " return;"));
+        }
+        Judged.fine(Judged.main(beside, "null; virtual void A.q(); null; virtual void Q.q(); null; virtual void P.p(); call void R.t(); return;"));
         // what a class above an interface has is not found from it, nor what is below
         line("null; @virtual void I.m();");
         line("null; @virtual void Object.m();");
