@@ -13,6 +13,7 @@ public final class ManyTest {
         heldOfMany();
         knotsOfMany();
         racesOfMany();
+        givenAndLetGoOfMany();
         stringsClassesMethods();
         fourThousand();
         Judged.end();
@@ -330,6 +331,28 @@ public final class ManyTest {
         }
         Judged.due("then", x.race(30, 0) * 1000 + x.race(30, 1), 17017);
         Judged.due("the last", x.race(464, 0) * 1000 + x.race(464, 1), 73073);
+    }
+
+    /** What is given and let go, each by its own method, of objects behind many others. */
+    private static void givenAndLetGoOfMany() {
+        String makes = times("new Object; pop; ", 40);
+        String k = "class K { static method void m() { " + makes + "return; } " + times("static method void t#() { new E#; throw; } static method Object g#() { new Object; give; } ", 8) + "} " + times("class E# extends Throwable { } ", 8);
+        String calls = times("call void K.t#(); call Object K.g#(); pop; ", 8);
+        String text = k + Judged.main("", times("new Object; pop; ", 30) + "call void K.m(); A: " + calls + "B: return; " + times("H#: return; ", 8) + times("catch E# A B H#; ", 8));
+        for (int policy = 0; policy < 2; policy++) {
+            ThreadJudge x = of(policy, text);
+            int main = x.method(x.count(5) - 1, 3);
+            int last = x.count(6) - 8;
+            Judged.due("objects", x.count(9), 30 + 40 + 16 + 1);
+            for (int n = 0; n < 8; n++) {
+                int t = x.method(18 + n * 2, 3);
+                int behind = main + 61 + n * 3 + 2;
+                Judged.due("given by " + n, x.holds(behind, 10, -1), 1);
+                Judged.due("site", x.object(x.holds(behind, 10, 0), 0), t + 2);
+                Judged.due("let go by " + n, x.holds(last + n, 10, -1), 1);
+                Judged.due("site", x.object(x.holds(last + n, 10, 0), 0), t);
+            }
+        }
     }
 
     /** STRINGS, CLASSES, METHODS with great numbers, as objects and as things. */
