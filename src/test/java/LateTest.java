@@ -200,6 +200,19 @@ public final class LateTest {
         same("to the first catch", at(x, 16, 10), "24 ");
         same("the rest to main's", at(x, x.count(6) - 1, 10), "26 5006 ");
         Judged.due("kept", x.field(0, 1, -1), 1);
+        // behind a catch, too
+        for (String order : new String[] {"abcd", "dcba", "bdac"}) {
+            StringBuilder k = new StringBuilder("class K { static field Object e; ");
+            for (int n = 0; n < 4; n++) {
+                char name = order.charAt(n);
+                k.append("static method void ").append(name).append("() { ").append(name == 'd' ? "new Cast; throw; } " : "push 1; pop; call void K." + (char) (name + 1) + "(); return; } ");
+            }
+            x = of(k + "} " + Judged.main("", "goto S; H: store 1; push 5; pop; load 1; putstatic K.e; return; S: A: push 1; pop; call void K.a(); B: return; catch Cast A B H;"));
+            int main = x.method(21, 3);
+            Judged.due("caught, " + order, x.holds(main + 1, 10, -1), 1);
+            Judged.due("behind it, " + order, x.holds(main + 3, 1, -1), 1);
+            Judged.due("kept, " + order, x.field(0, 1, -1), 1);
+        }
         x = of(Judged.main("class R { static method void r() { push 1; ifeq L; call void R.r(); L: push 1; ifeq M; call void R.s(); M: return; } static method void s() { call void R.r(); new Cast; throw; } } ", "A: call void R.r(); B: return; H: return; catch Throwable A B H;"));
         same("in a ring", at(x, x.count(6) - 1, 10), 22 + " 5006 ");
     }

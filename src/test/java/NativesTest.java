@@ -162,6 +162,12 @@ public final class NativesTest {
         // what is thrown
         x = of(Judged.main("", "A: new Cast; throw; B: return; H: return; catch Cast A B H;".replace("B: return; H:", "B: H:")));
         same("caught", at(x, 16, 10), "14 ");
+        // an array, and another one behind it
+        x = of(Judged.main("", "push 1; array Object; store 1; push 1; array Object; store 2; push 0; ifeq L; load 1; goto M; L: load 2; M: store 3; load 3; push 0; string \"s\"; setelement; load 3; push 0; element; pop; load 1; push 0; element; pop; load 2; push 0; element; pop; return;"));
+        same("both arrays", x.field(0, -1, -1) + " " + x.field(1, -1, -1), "1 1");
+        same("of the first", at(x, x.count(6) - 6, 10) + at(x, x.count(6) - 2, 10), "2000 2000 ");
+        x = of(Judged.main("", "push 1; array Object; store 1; push 1; array Object; store 2; load 1; push 0; string \"s\"; setelement; load 2; push 0; string \"t\"; setelement; push 0; ifeq L; load 1; goto M; L: load 2; M: push 0; element; pop; return;"));
+        same("of both", at(x, x.count(6) - 2, 10), "2000 2001 ");
         // what is given, what a field and an element hold
         x = of(Judged.main("class K { static field Object f; static method Object g() { new Object; give; } } ", "call Object K.g(); putstatic K.f; push 1; array Object; store 1; load 1; push 0; getstatic K.f; setelement; load 1; push 0; element; pop; return;"));
         same("given", at(x, 17, 10), "14 ");
