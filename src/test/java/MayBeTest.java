@@ -590,8 +590,8 @@ public final class MayBeTest {
 
     /** "find: for each CLASS of the receiver and STRING of the value: the first of the class, what it extends, .. that has a method with lines of this name (none with <) without parameters: leaves that METHOD" */
     private static void find() {
-        String k = "interface I { method void d() { return; } } class S { method void a() { return; } method void b() { return; } static method void st() { return; } } abstract class K extends S implements I { abstract method void a(); method void b(int) { return; } static method void b() { return; } method void <init>() { return; } method int n() { push 1; give; } } ";
-        // d 17, S.a 18, S.b 19, st 20, K.a 21, b(int) 22, b 23, <init> 24, n 25
+        String k = "interface I { method void d() { return; } } class S { method void a() { return; } method void b() { return; } static method void st() { return; } } abstract class K extends S implements I { abstract method void a(); method void b(int) { return; } static method void b() { return; } method void <init>() { return; } method int n() { push 1; give; } static method void <clinit>() { return; } } ";
+        // d 17, S.a 18, S.b 19, st 20, K.a 21, b(int) 22, b 23, <init> 24, n 25, <clinit> 26
         String[] names = {"a", "b", "st", "d", "n", "<init>", "<clinit>", "q", "", "wait"};
         int[] due = {18, 23, 20, -1, 25, -1, -1, -1, -1, -1};
         for (int k2 = 0; k2 < names.length; k2++) {

@@ -1245,6 +1245,10 @@ public final class StepsTest {
         raises("string \"Ab\"; call Class Class.named(String); string \"v\"; virtual Method Class.find(String); pop;", 15);
         raises("string \"Thread\"; call Class Class.named(String); string \"uncaught\"; virtual Method Class.find(String); pop;", 15);
         raises("string \"Main\"; call Class Class.named(String); string \"main\"; virtual Method Class.find(String); pop;", -1);
+        // none with <, also of a class that has them
+        for (String name : new String[] {"<init>", "<clinit>"}) {
+            says("class L { static method void <clinit>() { return; } method void <init>() { return; } } ", "A: string \"L\"; call Class Class.named(String); string \"" + name + "\"; virtual Method Class.find(String); pop; B: return; H: is NoMethod;" + P + "return; catch Throwable A B H;", 1);
+        }
         ThreadJudge x = begun(K, cls + "string \"m\"; virtual Method Class.find(String); return;");
         steps(x, 0, 4);
         Judged.due("of what it extends", x.thing(x.local(0, 10), 1), 4017);
