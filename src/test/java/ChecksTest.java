@@ -11,6 +11,8 @@ public final class ChecksTest {
         stackOfEight();
         atTheBeginning();
         whatIsLeft();
+        whatCallsLeave();
+        setsByWaysBack();
         takesAndLeaves();
         whereItGoesOn();
         withinACatch();
@@ -147,6 +149,46 @@ public final class ChecksTest {
         leaves("push 1; ifeq L; new A; goto M; L: new B; M:", "A B");
         leaves("push 1; ifeq L; push 1; goto M; L: null; M:", "int NULL");
         leaves("A: new A; store 1; B: goto E; H: E: return; catch NullPointer A B H; catch State A B H;".replace("E: return;", "load 1; pop; pop; E: null; pop; push 1;").replace("load 1; pop; pop;", "pop;"), "int");
+    }
+
+    /** "49, 50: receiver, values -> what it gives, if not void. 51: values -> likewise." */
+    private static void whatCallsLeave() {
+        String[] types = {"int", "Object", "B", "int[]", "B[]"};
+        String[] kinds = {"int", "Object", "B", "array", "array"};
+        for (int k = 0; k < types.length; k++) {
+            String gives = types[k] + (k == 0 ? " @(int) { push 1; give; } " : " @(int) { null; give; } ");
+            String g = "class B { } class G { method " + gives.replace("@", "g") + "static method " + gives.replace("@", "s") + "method void u() { null; load 0; push 1; # pop; pop; return; } } ";
+            for (String op : new String[] {"virtual @ G.g(int);", "special @ G.g(int);", "swap; pop; call @ G.s(int);"}) {
+                ThreadJudge x = Judged.loaded(Judged.main(g.replace("#", op.replace("@", types[k])), "return;"));
+                int i = x.method(19, 3) + x.method(19, 4) - 3;
+                Judged.due("height behind " + op + types[k], x.instruction(i, 3), 2);
+                int[] told = {-2, 0, 19, -5, -3, -4};
+                String[] names = {"int", "Object", "B", "array", "NULL", "NOTHING"};
+                for (int n = 0; n < told.length; n++) {
+                    Judged.due(names[n] + " behind " + op + types[k], x.kind(i, 11, told[n]), names[n].equals(kinds[k]) ? 1 : 0);
+                }
+            }
+        }
+    }
+
+    /** "SETS: the least ones such that what comes to an instruction holds all that its forerunners leave." by ways back, also where the last line is within a 'catch' */
+    private static void setsByWaysBack() {
+        String back = "goto S; H: pop; return; S: push 1; store 1; L: load 1; pop; null; store 1; # push 1; ifeq L; $ return; ";
+        for (int k = 0; k < 3; k++) {
+            String lines = back.replace("#", k == 0 ? "" : "A:").replace("$", k == 0 ? "" : "B:") + (k == 0 ? "" : k == 1 ? "catch Throwable A B H;" : "catch Throwable A B H; catch Cast A B H;");
+            ThreadJudge x = Judged.loaded(Judged.main("", lines));
+            Judged.due("int at first", x.kind(19, 1, -2), 1);
+            Judged.due("NULL by the way back", x.kind(19, 1, -3), 1);
+            Judged.due("int on the stack", x.kind(20, 10, -2), 1);
+            Judged.due("NULL on the stack", x.kind(20, 10, -3), 1);
+        }
+        // what comes to a catch by the last line alone, from above by a way back
+        ThreadJudge x = Judged.loaded(Judged.main("", "push 1; store 1; goto S; H: pop; load 1; pop; goto S; T: null; store 1; A: push 1; ifeq T; B: return; S: push 1; ifeq T; return; catch Throwable A B H;"));
+        Judged.due("NULL at S", x.kind(26, 1, -3), 1);
+        Judged.due("int at S", x.kind(26, 1, -2), 1);
+        Judged.due("NULL at H", x.kind(18, 1, -3), 1);
+        Judged.due("no int at H", x.kind(18, 1, -2), 0);
+        Judged.due("Throwable at H", x.kind(17, 10, 5), 1);
     }
 
     private static void leaves(String lines, String none) {

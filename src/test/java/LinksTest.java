@@ -37,6 +37,7 @@ public final class LinksTest {
         virtualCalls();
         specialCalls();
         staticCalls();
+        typesOfEach();
         lambdas();
         lambdaIsMadeFor();
         locals();
@@ -390,6 +391,9 @@ public final class LinksTest {
         eleven("class A implements Runnable { method int @run() { push 1; give; } }");
         eleven("class A extends Thread { method A @uncaught(Throwable) { null; give; } }");
         eleven("class A { method int[] m() { null; give; } } class B extends A { method A[] @m() { null; give; } }");
+        // of names with < no type is asked but by what is said of <init>, <clinit>
+        eleven("class B extends A { method void <init>() { return; } } class A { method int @<init>() { push 1; give; } }");
+        eleven("class B extends A { method void <init>(A) { return; } } class A { method A @<init>(A) { load 0; give; } }");
         fine("class A { method void m() { return; } } class B extends A { static method int m() { push 1; give; } }");
         fine("class A { static method void m() { return; } } class B extends A { method int m() { push 1; give; } }");
         fine("class A { method void m() { return; } } class B extends A { method int m(int) { push 1; give; } method void m() { return; } }");
@@ -412,6 +416,18 @@ public final class LinksTest {
         fine(i + "interface J { static method int m(int) { push 1; give; } } class C implements I, J { }");
         fine(i + "interface J { abstract method int m(int); } class C implements I { } class D implements J { }");
         fine("class A { method void <init>(int) { return; } } class B extends A { method void <init>(int) { return; } }");
+        eleven("class C extends B { } class B extends A { method void <init>() { return; } } class A { method int @<init>() { push 1; give; } }");
+        eleven("class C extends B { } class B extends A { method int @<x>() { push 1; give; } } class A { method void <x>() { return; } }");
+        // two of one class are another fault, and stand elsewhere
+        eleven("class C extends A { } class A { method int f() { push 1; give; } method void @f() { return; } }");
+        eleven("class C extends A { } class A { method void f() { return; } method int @f() { push 1; give; } method void f() { return; } }");
+        // static ones do not count, whichever stands ahead of the other
+        String a = "class A { static method int m(int) { push 1; give; } } ";
+        fine(i + a + "class C extends A implements I { }");
+        fine(a + i + "class C extends A implements I { }");
+        fine("class C extends A implements I { } " + a + i);
+        fine("class C extends B { } class B extends A { method void m(int) { return; } } " + a);
+        fine("class C extends B { } " + a + "class B extends A { method void m(int) { return; } } ");
     }
 
     /** "(Names that are no class are one type by these two.)" */
@@ -601,10 +617,27 @@ public final class LinksTest {
         fineLine("push 1; call void Out.print(int); null; call void Runtime.hook(Thread);");
     }
 
+    /** Each instruction tells its own types, also behind one that tells six. */
+    private static void typesOfEach() {
+        String a = "class A { static method void a(int, int, int, int, int, int) { return; } static method void b(A) { return; } static method void c(A[], A, int, int[], A, Object) { return; } } ";
+        String six = "push 1; push 2; push 3; push 4; push 5; push 6; ";
+        ThreadJudge x = Judged.loaded(Judged.main(a, "null; " + six + "call void A.a(int, int, int, int, int, int); call void A.b(A); null; null; null; push 1; null; null; null; call void A.c(A[], A, int, int[], A, Object); call void A.b(A); return;"));
+        int[] at = {24, 25, 33, 34};
+        int[] due = {17, 18, 19, 18};
+        for (int k = 0; k < at.length; k++) {
+            Judged.due("method of " + at[k], x.instruction(at[k], 2), due[k]);
+        }
+    }
+
     /** "52. it is not static, or native." .. "52: c is no interface" .. "the last parameters of m are not that one's, or m gives another type than that one" */
     private static void lambdas() {
         String f = "interface F { abstract method int f(int, A); } interface V { abstract method void v(); } class A { static method int k(Object, int[], int, A) { push 1; give; } static method int e(int, A) { push 1; give; } static method int w(int, B) { push 1; give; } static method int s(int) { push 1; give; } static method int r(A, int) { push 1; give; } static method void n(int, A) { return; } static method Object o(int, A) { null; give; } static method void v() { return; } static method void p(int) { return; } method void m() { return; } static method void <clinit>() { return; } static method int t(int, Object) { push 1; give; } static method int x(int[], A) { push 1; give; } static method int y(A, A) { push 1; give; } static method int z(int[], int, Object) { push 1; give; } } class B extends A { } interface P { abstract method void p(int); } interface H { abstract method void h(Thread); } abstract class Abs { abstract method void v(); } ";
         Judged.fine(Judged.main(f, "null; null; lambda F int A.k(Object, int[], int, A); lambda F int A.e(int, A); lambda V void A.v(); lambda V void B.v(); push 1; lambda V void A.p(int); lambda P void A.p(int); return;"));
+        // m has fewer than the interface's, behind a method with six
+        String six = "class S { static method void a(int, int, int, int, int, int) { return; } static method int b(A) { push 1; give; } static method int c() { push 1; give; } } ";
+        Judged.fault(12, Judged.main(six + f, "@lambda F int S.b(A); pop; return;"));
+        Judged.fault(12, Judged.main(six.replace("int) { return", "A) { return") + f, "@lambda F int S.c(); pop; return;"));
+        Judged.fault(12, Judged.main(six + f, "@lambda F int S.c(); pop; return;"));
         for (String wrong : new String[] {"A void A.v()", "Abs void A.v()", "Object void A.v()", "F int A.w(int, B)", "F int A.s(int)", "F int A.r(A, int)", "F void A.n(int, A)", "F Object A.o(int, A)",
             "F int A.t(int, Object)", "F int A.x(int[], A)", "F int A.y(A, A)", "F int A.z(int[], int, Object)", "V void A.m()", "P void Out.print(int)", "H void Runtime.hook(Thread)", "V void A.<clinit>()", "F void A.v()", "V void Object.notify()", "V int A.e(int, A)"}) {
             Judged.fault(12, Judged.main(f, "@lambda " + wrong + "; pop; return;"));
