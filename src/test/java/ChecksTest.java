@@ -466,6 +466,15 @@ public final class ChecksTest {
         operands("other E", "E: return;", "reference", "reference");
         operands("ifnull E", "E: return;", "reference");
         operands("ifsome E", "E: return;", "reference");
+        for (int a = 0; a < KINDS.length; a++) {
+            String lines = "null; enter; " + MAKES[a] + " @exit; return;";
+            if (takes("reference", a)) {
+                fine(lines.replace("@", ""));
+            } else {
+                wrong(23, lines);
+            }
+            wrong(23, "null; enter; push 1; ifeq X; push 1; goto Y; X: " + MAKES[a] + " Y: @exit; return;");
+        }
         operands("get A.n", "return;", "A");
         operands("put A.n", "return;", "A", "int");
         operands("put A.a", "return;", "A", "A");

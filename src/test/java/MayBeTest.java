@@ -8,6 +8,8 @@ public final class MayBeTest {
         goesOnAlone();
         mainBegins();
         whatLetsBegin();
+        interfacesBegin();
+        allLocalsToACatch();
         whatDoesNotLetBegin();
         fieldsAndElements();
         lambdasHave();
@@ -235,6 +237,50 @@ public final class MayBeTest {
                 Judged.due("starts none", x.calls(i, true, -1), 0);
             }
         }
+    }
+
+    /** "If a class begins, what it extends does, and its <clinit> with NONE is an instance, if it has one." also of an interface; what is above it behind its 'implements' does not begin */
+    private static void interfacesBegin() {
+        String i = "interface I implements J { static field int f; static method void s() { return; } static method void <clinit>() { new Object; putstatic Main.o; return; } } interface J { static method void <clinit>() { return; } } class A implements I { static method void t() { return; } } ";
+        String[] lines = {"getstatic I.f; pop;", "push 1; putstatic I.f;", "call void I.s();", "string \"I\"; call Class Class.named(String); pop;"};
+        for (String line : lines) {
+            for (int policy = 0; policy < 4; policy++) {
+                ThreadJudge x = of(policy, i + "class Main { static field Object o; static method void main() { " + line + " return; } }");
+                Judged.due("I by " + line, x.begins(19), 1);
+                Judged.due("not J", x.begins(20), 0);
+                Judged.due("I's <clinit>", x.reached(18, 0), 1);
+                Judged.due("not J's", x.reached(19, 0), 0);
+                Judged.due("Object is made there", object(x, 15, -1) >= 0 ? 1 : 0, 1);
+                Judged.due("nothing is open", x.count(15), 0);
+                x.begin();
+                x.run(100, 1);
+                Judged.due("classes that began", x.count(23), 3 + (line.startsWith("string") ? 1 : 0));
+                Judged.yes("foreseen", x.foreseen());
+            }
+        }
+        ThreadJudge x = of(0, Judged.main(i, "new A; pop; call void A.t(); return;").replace("class Main {", "class Main { static field Object o;"));
+        Judged.due("what a class implements does not begin", x.begins(19) + x.begins(20), 0);
+        Judged.due("no <clinit>", x.reached(18, 0) + x.reached(19, 0), 0);
+    }
+
+    /** A catch has each of the ten locals as it is before each instruction within. */
+    private static void allLocalsToACatch() {
+        StringBuilder lines = new StringBuilder();
+        for (int k = 0; k < 10; k++) {
+            lines.append("new Object; store ").append(k).append("; ");
+        }
+        ThreadJudge x = of(0, Judged.main("", lines + "A: null; throw; B: H: pop; return; catch Throwable A B H;"));
+        for (int k = 0; k < 10; k++) {
+            same("local " + k, at(x, 36, k), (14 + 2 * k) + " ");
+        }
+        same("what is thrown", at(x, 36, 10), "5006 ");
+        x.begin();
+        x.run(22, 0);
+        for (int k = 0; k < 10; k++) {
+            Judged.due("thing in local " + k, x.local(0, k), k);
+        }
+        Judged.due("at the catch", x.state(0, 2), 36);
+        Judged.yes("foreseen", x.foreseen());
     }
 
     /** What is not named there lets no class begin: 38, 39, 43, 47 to 50, 52, and what is never come to. */
@@ -798,6 +844,8 @@ public final class MayBeTest {
         Judged.due("of Class", x.object(0, 2), 3);
         x = of(0, Judged.main("class K { synchronized method void m() { return; } } ", "new K; virtual void K.m(); return;"));
         Judged.due("no CLASS of what is not static", x.object(0, 0), 15);
+        Judged.due("but what is made and NullPointer", x.count(9), 2);
+        Judged.due("no CLASS", object(x, 3019, -1), -1);
         x = of(0, "class Main { static synchronized method void main() { return; } }");
         Judged.due("MAIN's", x.object(0, 0), 3019);
         x = of(0, Judged.main("excluded class K { static synchronized method void s() { return; } } ", "call void K.s(); return;"));
