@@ -31,6 +31,7 @@ public final class AgainTest {
         }
         runs();
         hooksAgain();
+        knotsAgain();
         Judged.end();
     }
 
@@ -95,6 +96,32 @@ public final class AgainTest {
         Judged.due("all are ended", x.state(0, 0) * 10 + x.state(1, 0), 44);
         Judged.due("none was noted", x.count(19), 2);
         Judged.due("none goes on", x.run(10, 1), 0);
+    }
+
+    /** Behind an analysis that found knots: another text, of the same instructions but for what is wanted, has none. */
+    private static void knotsAgain() {
+        String two = "class Main { static field Object a; static field Object b; static method void one() { getstatic Main.a; enter; @ null; exit; return; } static method void two() { getstatic Main.b; enter; # null; exit; return; } "
+            + "static method void main() { new Object; putstatic Main.a; new Object; putstatic Main.b; new Thread; virtual void Thread.start(); call void Main.one(); call void Main.two(); return; } }";
+        String[] lines = {"getstatic Main.a; enter; null; exit;", "getstatic Main.b; enter; null; exit;", "getstatic Main.a; virtual void Object.notify(); null; pop;", "null; pop; null; pop;", "getstatic Main.a; virtual void Object.wait(); null; pop;", "getstatic Main.b; virtual void Object.wait(); null; pop;"};
+        for (int first = 0; first < lines.length; first++) {
+            for (int second = 0; second < lines.length; second++) {
+                String text = two.replace("@", lines[first]).replace("#", lines[second]);
+                boolean ab = first == 1 || first == 5;
+                boolean ba = second == 0 || second == 4;
+                ThreadJudge x = Judged.of(two.replace("@", lines[1]).replace("#", lines[0]));
+                x.load();
+                for (int policy = 0; policy < 2; policy++) {
+                    x.analyse(policy, 300);
+                    Judged.due("both orders", x.count(13), 2);
+                }
+                x.clear();
+                Judged.feed(x, text);
+                Judged.due("load", x.load(), 0);
+                x.analyse(0, 300);
+                Judged.due("behind it " + text, x.count(13), ab && ba ? 2 : 0);
+                Judged.due("first", x.knot(0, 0), ab && ba ? 17 : -1);
+            }
+        }
     }
 
     /** The first answer that is not as due; - 1 without. */

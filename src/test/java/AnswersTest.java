@@ -88,6 +88,14 @@ public final class AnswersTest {
         is("starting", 24);
         wrong("@All");
         wrong("@mains");
+        wrong("@<init>");
+        wrong("@<clinit>");
+        wrong("all | @<clinit> ");
+        // a 53 that no 54 ends, one that is not come to, and none
+        x = Judged.loaded(Judged.main("class K { static method void a() { null; enter; L: goto L; } static method void b() { return; null; enter; } static method void c() { null; throw; } static synchronized method void d() { return; } synchronized method void e() { return; } static method void f() { null; enter; null; exit; return; } } ", "return;"));
+        x.analyse(0, 300);
+        is("locking", 17, 18, 20, 21, 22);
+        anew();
     }
 
     /** "(these words come before classes of such names)" */

@@ -10,6 +10,7 @@ public final class ThreadsTest {
         singleThreads();
         threadsRun();
         beforeAThread();
+        hooksAmongStarts();
         beforeNeedsAllInMain();
         beforeNeedsMainOnce();
         theBeginning();
@@ -22,6 +23,7 @@ public final class ThreadsTest {
         behindNeedsJoinAlone();
         behindNeedsEveryWay();
         parallelThreads();
+        parallelInSomeInstances();
         parallelBadInputs();
         surelyHeld();
         surelyHeldByLock();
@@ -281,6 +283,22 @@ public final class ThreadsTest {
         meets("new T; dup; lambda Runnable void W.v(); special void Thread.<init>(Runnable); virtual void Thread.start(); return;", "000001");
     }
 
+    /** What hooks one thread does not start another one, nor does what starts one hook another one. */
+    private static void hooksAmongStarts() {
+        String t = "class T extends Thread { method void run() { return; } } class U extends Thread { method void run() { return; } } ";
+        // T.run 14, U.run 15, main 16 ..
+        ThreadJudge x = of(Judged.main(t, "new T; store 1; new U; store 2; load 1; virtual void Thread.start(); load 2; call void Runtime.hook(Thread); load 1; virtual void Thread.join(); push 1; pop; return;"));
+        for (int i = 16; i < 29; i++) {
+            Judged.due("T and " + i, x.parallel(i, 14), i > 21 && i < 26 ? 1 : 0);
+            Judged.due("U and " + i, x.parallel(i, 15), i > 23 ? 1 : 0);
+        }
+        x = of(Judged.main(t, "new T; store 1; new U; store 2; load 2; call void Runtime.hook(Thread); push 1; pop; load 1; call void Runtime.hook(Thread); load 2; virtual void Thread.join(); return;"));
+        for (int i = 16; i < 29; i++) {
+            Judged.due("T, hooked, and " + i, x.parallel(i, 14), i > 25 ? 1 : 0);
+            Judged.due("U, hooked, and " + i, x.parallel(i, 15), i > 21 && i < 28 ? 1 : 0);
+        }
+    }
+
     /** "if MAIN is ONCE" */
     private static void beforeNeedsMainOnce() {
         meets("new T; virtual void Thread.start(); return; call void Main.main();", "001-");
@@ -296,6 +314,10 @@ public final class ThreadsTest {
         Judged.due("S's beginning too", x.parallel(16, 14), 1);
         x = of("class T extends Thread { method void run() { return; } } class S { static method void <clinit>() { push 1; pop; return; } } class Main extends S { static method void main() { push 1; ifeq L; new T; virtual void Thread.start(); L: return; } }");
         Judged.due("if MAIN is once it is", x.parallel(16, 14), 0);
+        // MAIN is called by a lambda, so its class does not begin by that: the BEGINNING alone is a top
+        String m = "class T extends Thread { method void run() { return; } } class S { static method void <clinit>() { push 1; pop; return; } } class Main extends S { static method void main() { @ new T; virtual void Thread.start(); return; } }";
+        Judged.due("nor if a lambda calls MAIN", of(m.replace("@", "push 1; ifeq L; lambda Runnable void Main.main(); virtual void Runnable.run(); L:")).parallel(15, 14), 1);
+        Judged.due("a lambda that none calls", of(m.replace("@", "lambda Runnable void Main.main(); pop;")).parallel(15, 14), 0);
     }
 
     /** "and the BEGINNING, if a <clinit> of MAIN's class, or of what that extends, is it or calls it so" .. "(to the BEGINNING none does)" .. "(the BEGINNING never)" */
@@ -450,6 +472,28 @@ public final class ThreadsTest {
         // with thread 0 it does not matter whether the other one is single
         x = of(Judged.main(t, "L: new U; virtual void Thread.start(); push 1; ifeq L; return;"));
         Judged.due("main in the loop", x.parallel(x.count(6) - 4, 16), 1);
+    }
+
+    /** "Two instructions in instances may be PARALLEL" of any instances of both methods, whichever were there first */
+    private static void parallelInSomeInstances() {
+        String t = "class T extends Thread { method void run() { # return; } } class W { static method void w() { return; } static method void v() { call void W.w(); return; } static method void u() { call void W.v(); return; } } ";
+        String[] calls = {"call void W.w();", "call void W.v();", "call void W.u();"};
+        for (String ofRun : calls) {
+            for (String ofMain : calls) {
+                for (int later = 0; later < 2; later++) {
+                    String start = "new T; virtual void Thread.start(); ";
+                    ThreadJudge x = of(1, Judged.main(t.replace("#", ofRun), (later > 0 ? start + ofMain : ofMain + start) + " push 1; pop; return;"));
+                    int w = x.method(18, 3);
+                    int last = x.count(6) - 1;
+                    String what = ofRun + " of run, " + ofMain + (later > 0 ? " behind" : " ahead of") + " the start: ";
+                    Judged.due(what + "MAIN's end with w", x.parallel(last, w), 1);
+                    Judged.due(what + "w with MAIN's end", x.parallel(w, last), 1);
+                    Judged.due(what + "w with w", x.parallel(w, w), later);
+                    Judged.due(what + "run with w", x.parallel(14, w), later);
+                    Judged.due(what + "w with run", x.parallel(w, 14), later);
+                }
+            }
+        }
     }
 
     private static void parallelBadInputs() {
