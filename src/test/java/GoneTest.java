@@ -154,6 +154,13 @@ public final class GoneTest {
         x.begin();
         Judged.due("the second thread", x.state(1, 0), -1);
         Judged.due("a static field", x.value(0, 1), 0);
+        for (int n = 0; n < 4; n++) {
+            for (int f = -2; f < 4; f++) {
+                if (f != 1 && f != 2) {
+                    Judged.due("no thing " + n + ", " + f, x.value(n, f), -1);
+                }
+            }
+        }
         for (int what = 17; what < 25; what++) {
             Judged.due("count behind begin " + what, x.count(what), what == 19 ? 1 : what == 23 ? 2 : 0);
         }

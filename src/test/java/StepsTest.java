@@ -33,6 +33,7 @@ public final class StepsTest {
         uncaughtOnce();
         enterAndExit();
         lastThingEntered();
+        callsWithoutLocks();
         locks();
         lockOfFirstFrames();
         waitAndNotify();
@@ -210,6 +211,10 @@ public final class StepsTest {
         makes(k, "", 0, "A: null; throw; B: null; H: pop; return; catch Throwable A B H;", true);
         makes(k, "new State; store 1;", 1, "A: load 1; throw; B: null; H: pop; return; catch Throwable A B H;", false);
         makes(k, "new Thread; store 1;", 1, "load 1; virtual void Thread.start();", false);
+        // a LOCK that is a receiver's is a thing already
+        String n = "class N { synchronized method void n() { return; } synchronized method Object o() { load 0; give; } } ";
+        makes(n, "new N; store 1;", 1, "load 1; virtual void N.n();", false);
+        makes(n, "new N; store 1; string \"N\"; call Class Class.named(String); string \"o\"; virtual Method Class.find(String); store 2;", 5, "load 2; load 1; virtual Object Method.invoke(Object); pop;", false);
     }
 
     private static ThreadJudge deep(int frames, String classes, String op) {
@@ -907,6 +912,29 @@ public final class StepsTest {
         Judged.due("54 never is about the LOCK", x.thing(2, 1), 5012);
         Judged.due("ended", x.state(0, 0), 4);
         Judged.due("let go", x.thing(0, 3), 0);
+    }
+
+    /** What is not 'synchronized' waits for no LOCK, though the thing or the CLASS is entered by another thread. */
+    private static void callsWithoutLocks() {
+        String k = "class K { method void p() { return; } static method void q() { return; } method Object o() { null; give; } static method Object r() { null; give; } synchronized method void m() { return; } static synchronized method void s() { return; } static synchronized method void hold() { W: goto W; } method void init() { return; } } "
+            + "class T extends Thread { method void run() { getstatic Main.k; enter; call void K.hold(); null; exit; return; } } class Main { static field K k; static field Method o; static field Method r; static field Class c; static method void main() { new K; putstatic Main.k; "
+            + "string \"K\"; call Class Class.named(String); dup; putstatic Main.c; dup; string \"o\"; virtual Method Class.find(String); putstatic Main.o; string \"r\"; virtual Method Class.find(String); putstatic Main.r; new T; virtual void Thread.start(); push 1; pop; @ return; } }";
+        String[] goes = {"getstatic Main.k; virtual void K.p();", "call void K.q();", "getstatic Main.k; special void Object.<init>();", "lambda Runnable void K.q(); virtual void Runnable.run();", "getstatic Main.o; getstatic Main.k; virtual Object Method.invoke(Object); pop;",
+            "getstatic Main.r; null; virtual Object Method.invoke(Object); pop;", "getstatic Main.c; virtual Object Class.newInstance(); pop;", "new K; virtual void K.m();", "new K; enter; null; exit;", "getstatic Main.k; is K; pop;"};
+        String[] waits = {"getstatic Main.k; virtual void K.m();", "call void K.s();", "lambda Runnable void K.s(); virtual void Runnable.run();", "getstatic Main.k; enter; null; exit;", "getstatic Main.c; enter; null; exit;"};
+        for (int n = 0; n < goes.length + waits.length; n++) {
+            boolean free = n < goes.length;
+            String lines = free ? goes[n] : waits[n - goes.length];
+            ThreadJudge x = begun(k.replace("@", lines));
+            steps(x, 0, 16);
+            steps(x, 1, 4);
+            Judged.due("K is entered", x.thing(0, 4), 1);
+            for (int step = 0; step < 20 && x.step(0) == 1; step++) {
+                continue;
+            }
+            Judged.due((free ? "ends: " : "waits: ") + lines, x.state(0, 0), free ? 4 : 1);
+            Judged.due("the other one goes on", x.step(1), 1);
+        }
     }
 
     /** "A 'synchronized' method that an instruction calls: the instruction waits likewise, its LOCK is entered when the frame comes" .. "A CLASS is a thing, if not before, when its LOCK is entered. The LOCK is let go when the frame goes" */
