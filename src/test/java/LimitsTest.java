@@ -5,6 +5,7 @@ public final class LimitsTest {
         objects();
         instances();
         code();
+        lastInstructions();
         things();
         threads();
         Judged.end();
@@ -99,6 +100,64 @@ public final class LimitsTest {
         Judged.due("fields", x.count(4), 40);
         x.analyse(3, 300);
         askAll(x);
+    }
+
+    /** "1,000 instructions": races, clashes, knots and calls of wait() of the first and the last ones. */
+    private static void lastInstructions() {
+        String run = "method void run() { push 1; putstatic Main.n; string \"b\"; enter; string \"a\"; enter; string \"a\"; exit; string \"b\"; exit; return; } } ";
+        String lines = "new T; virtual void Thread.start(); new U; virtual void Thread.start(); ";
+        String ends = "string \"a\"; enter; string \"b\"; enter; string \"b\"; exit; string \"a\"; virtual void Object.wait(); string \"a\"; exit; push 1; putstatic Main.n; return;";
+        // T's run 14 .., U's run 14 + 11 + 8 * 113 .., main's
+        String fill = times("static method void f#() { " + times("null; pop; ", 56) + "return; } ", 8);
+        int main = 1000 - 22 - 8 * 113;
+        String text = "class T extends Thread { " + run + "class F { " + fill + "} class U extends Thread { " + run + "class Main { static field int n; static method void main() { " + lines + "goto Z; Z: " + times("push 1; pop; ", (main - 18) / 2) + ends + " } }";
+        ThreadJudge x = Judged.loaded(text);
+        Judged.due("instructions", x.count(6), 1014);
+        x.analyse(1, 300);
+        int[] writes = {15, 14 + 11 + 904 + 1, 1012};
+        Judged.due("races", x.count(12), 3);
+        for (int k = 0; k < 3; k++) {
+            Judged.due("first of " + k, x.race(k, 0), writes[k < 2 ? 0 : 1]);
+            Judged.due("second of " + k, x.race(k, 1), writes[k < 1 ? 1 : 2]);
+            Judged.due("field of " + k, x.race(k, 2), 1);
+        }
+        Judged.due("no more", x.race(3, 0), -1);
+        int[] enters = {19, 14 + 11 + 904 + 5, 1014 - 10};
+        Judged.due("knots", x.count(13), 3);
+        for (int k = 0; k < 3; k++) {
+            Judged.due("knot " + k, x.knot(k, 0), enters[k]);
+        }
+        Judged.due("waits", x.count(14), 1);
+        Judged.due("the call of wait()", x.waits(0, 0), 1014 - 6);
+        Judged.due("rash", x.waits(0, 1), 2);
+        Judged.due("the last with the first", x.parallel(1013, 14), 1);
+        Judged.due("the last may hold nothing", x.held(1013, false, -1), 0);
+        x.begin();
+        for (int t = 0; t < 3; t++) {
+            for (int k = 0; k < 90 && x.step(t) == 1; k++) {
+                continue;
+            }
+        }
+        Judged.due("main sleeps", x.state(0, 0), 2);
+        Judged.due("one clash", x.count(21), 1);
+        Judged.due("of T", x.clash(0, 0), writes[0]);
+        Judged.due("and U", x.clash(0, 1), writes[1]);
+        Judged.yes("foreseen", x.foreseen());
+        ThreadJudge y = Judged.loaded(text.replace("virtual void Object.wait();", "virtual void Object.notify();"));
+        y.analyse(0, 300);
+        for (int draw = 0; draw < 3; draw++) {
+            y.begin();
+            // main to its end, then U, then T
+            for (int t : draw == 0 ? new int[] {0, 2, 1} : draw == 1 ? new int[] {0, 1, 2} : new int[] {0, 2}) {
+                for (int k = 0; k < 90 && y.step(t) == 1; k++) {
+                    continue;
+                }
+            }
+            Judged.due("clashes", y.count(21), draw == 2 ? 1 : 3);
+            Judged.due("first", y.clash(0, 0), draw == 1 ? writes[0] : writes[1]);
+            Judged.due("with main", y.clash(0, 1), writes[2]);
+            Judged.yes("foreseen", y.foreseen());
+        }
     }
 
     private static void things() {
