@@ -4697,10 +4697,6 @@ public final class ThreadJudge {
             return (v & REFERENCE) != 0;
         }
 
-        private static long number(int v) {
-            return v & 0xffffffffL;
-        }
-
         private void fillDefaults(int row) {
             for (int f = 0; f < FIELDS; f++) {
                 boolean number = f < p.fields && p.fld[F_TYPE][f] == INT;

@@ -32,7 +32,26 @@ public final class AgainTest {
         runs();
         hooksAgain();
         knotsAgain();
+        onceAgain();
         Judged.end();
+    }
+
+    /** The first of all methods is once by one policy, and by another text it is not. */
+    private static void onceAgain() {
+        String one = Judged.main("", "new Object; special void Object.<init>(); return;");
+        ThreadJudge x = Judged.loaded(one);
+        x.analyse(0, 300);
+        Judged.due("called by one", x.reached(0, 1), 1);
+        x.clear();
+        Judged.feed(x, one.replace("new Object;", "new Object; dup; special void Object.<init>();"));
+        Judged.due("loaded", x.load(), 0);
+        x.analyse(0, 300);
+        Judged.due("called by two", x.reached(0, 1), 0);
+        x.clear();
+        Judged.feed(x, Judged.main("", "return;"));
+        Judged.due("loaded", x.load(), 0);
+        x.analyse(0, 300);
+        Judged.due("called by none", x.reached(0, 1), 0);
     }
 
     /** Runs anew, behind others of the same object: all that may be told. */

@@ -5,6 +5,7 @@ public final class LimitsTest {
         objects();
         instances();
         code();
+        hooks();
         lastInstructions();
         things();
         threads();
@@ -100,6 +101,36 @@ public final class LimitsTest {
         Judged.due("fields", x.count(4), 40);
         x.analyse(3, 300);
         askAll(x);
+        // the last field, and none behind it
+        String fields = "class A { " + times("field int f#; ", 38) + "static field int last; } ";
+        x = Judged.loaded(fields + Judged.main("", "new A; push 7; putstatic A.last; pop; return;"));
+        x.analyse(0, 300);
+        Judged.due("no field 40 holds anything", x.field(0, 40, -1), -1);
+        Judged.due("a static one", x.field(-1, 39, -1), 0);
+        x.begin();
+        x.run(5, 1);
+        Judged.due("the last field", x.value(-1, 39), 7);
+        Judged.due("a field of the thing", x.value(0, 38), 0);
+        Judged.due("no field 40", x.value(0, 40), -1);
+        Judged.fault(12, fields + Judged.main("", "new A; @get A.g; pop; return;"));
+        Judged.fault(12, fields + Judged.main("", "@getstatic A.g; pop; return;"));
+    }
+
+    /** "hook: it is noted": as many as there are things; "if that would be more than 12 threads, none of them does, and the run is FULL". */
+    private static void hooks() {
+        String lines = "L: new Thread; call void Runtime.hook(Thread); inc 1 -1; load 1; ifgt L; return;";
+        for (int n : new int[] {1, 11, 12, 150, 400}) {
+            ThreadJudge x = Judged.loaded(Judged.main("", "push " + n + "; store 1; " + lines));
+            x.analyse(0, 300);
+            x.begin();
+            int steps = 2 + n * 5 + 1;
+            int done = x.run(2000, n) + (steps > 2000 ? x.run(steps - 2000, n) : 0);
+            Judged.due("things of " + n, x.count(18), n);
+            Judged.due("steps of " + n, n > 11 ? done : 0, n > 11 ? steps : 0);
+            Judged.due("threads of " + n, x.count(19), n > 11 ? 1 : 1 + n);
+            Judged.due("full by " + n, x.count(24), n > 11 ? 1 : 0);
+            Judged.yes("foreseen with " + n, x.foreseen());
+        }
     }
 
     /** "1,000 instructions": races, clashes, knots and calls of wait() of the first and the last ones. */

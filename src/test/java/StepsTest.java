@@ -320,6 +320,20 @@ public final class StepsTest {
         y.run(2000, 1);
         Judged.due("full", y.count(24), 1);
         Judged.due("Main and Object alone", y.count(23), 2);
+        // MAIN's own LOCK: its CLASS would be one thing too many
+        for (int more = 0; more < 2; more++) {
+            y = begun("class Main { static method void <clinit>() { push " + (399 + more) + "; store 1; L: new Object; pop; inc 1 -1; load 1; ifgt L; return; } static synchronized method void main() { push 1; return; } }");
+            while (y.state(0, 1) == 2) {
+                y.step(0);
+            }
+            int done = y.count(17);
+            Judged.due("things of <clinit>", y.count(18), 399 + more);
+            Judged.due("enters its LOCK", y.step(0), 1 - more);
+            Judged.due("full by the CLASS", y.count(24), more);
+            Judged.due("things", y.count(18), 400);
+            Judged.due("steps", y.count(17), done + 1 - more);
+            Judged.due("goes on", y.step(0), 1 - more);
+        }
         Judged.yes("begin anew", x.begin());
         Judged.due("not full any more", x.count(24), 0);
         Judged.due("goes on", x.step(0), 1);
