@@ -308,6 +308,7 @@ public final class AnswersTest {
         is("(".repeat(20) + "main" + ")".repeat(20), 24);
         wrong("(".repeat(20) + "@(main" + ")".repeat(21));
         wrong("(".repeat(20) + "@(");
+        anew();
         is("from(".repeat(20) + "A.s" + ")".repeat(20), 19, 20, 21);
         wrong("from(".repeat(20) + "from@(A.s");
         // those that were closed do not count

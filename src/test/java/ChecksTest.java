@@ -25,6 +25,8 @@ public final class ChecksTest {
         rowAtTheEnd();
         otherRow();
         eachOperand();
+        nothingIsTaken();
+        lastClass();
         elements();
         arraysOfBothSorts();
         localsThatMayBeNothing();
@@ -270,6 +272,15 @@ public final class ChecksTest {
         // what is not come to goes on to none
         x = Judged.loaded(Judged.main("", "return; A: return; B: pop; H: return; catch State A B H;"));
         Judged.due("not from there", x.instruction(17, 3), -1);
+        x = Judged.loaded(Judged.main("", "push 1; goto H; A: null; pop; B: return; H: return; catch State A B H; catch Cast A B H;"));
+        Judged.due("come to by another way", x.instruction(19, 3), 1);
+        Judged.due("int is there", x.kind(19, 10, -2), 1);
+        Judged.due("no State from there", x.kind(19, 10, 13), 0);
+        Judged.due("no Cast", x.kind(19, 10, 9), 0);
+        x = Judged.loaded(Judged.main("", "C: push 1; pop; D: return; A: null; pop; B: return; H: return; catch State A B H; catch Cast C D H;"));
+        Judged.due("come to by another 'catch'", x.instruction(20, 3), 1);
+        Judged.due("its class", x.kind(20, 10, 9), 1);
+        Judged.due("not the one from there", x.kind(20, 10, 13), 0);
         // its first label's instruction is within, its second's is not
         x = Judged.loaded(Judged.main("", "return; A: push 1; B: return; H: return; catch State A B H;"));
         Judged.due("within none that is come to", x.instruction(17, 3), -1);
@@ -501,6 +512,109 @@ public final class ChecksTest {
         operands("lambda I void A.u(I, Object)", "return;", "I", "Object");
         operands("enter", "null; exit; return;", "reference");
         operands("throw", "", "Throwable");
+    }
+
+    /** Lines of which one takes what a local that is NOTHING holds: any kind is taken there, but int, references and arrays are other ones. */
+    private static void takesNothing(String op, String tail, String ahead, String... wants) {
+        for (int k = 0; k < wants.length; k++) {
+            boolean any = wants[k].equals("any");
+            StringBuilder lines = new StringBuilder("goto S; T: ");
+            lines.append(any ? "" : "@").append(op).append("; ").append(tail).append(" S: ").append(ahead);
+            for (int j = 0; j < wants.length; j++) {
+                String value = wants[j].equals("int") ? "push 1; " : "null; ";
+                lines.append(j != k ? value : any ? "@load 9; " : "load 9; ");
+            }
+            wrong(23, lines + "goto T;");
+        }
+    }
+
+    /** "A reference is any kind but int and NOTHING." and the first instruction that holds counts, not the one that took NOTHING from a local */
+    private static void nothingIsTaken() {
+        for (String op : "add sub mul div rem and or xor shl shr".split(" ")) {
+            takesNothing(op, "return;", "", "int", "int");
+        }
+        for (String op : "ifeq ifne iflt ifge ifgt ifle".split(" ")) {
+            takesNothing(op + " E", "E: return;", "", "int");
+        }
+        for (String op : "cmpeq cmpne cmplt cmpge cmpgt cmple".split(" ")) {
+            takesNothing(op + " E", "E: return;", "", "int", "int");
+        }
+        for (String op : "neg,array int,array A".split(",")) {
+            takesNothing(op, "return;", "", "int");
+        }
+        for (String op : "pop,dup,store 1".split(",")) {
+            takesNothing(op, "return;", "", "any");
+        }
+        takesNothing("under", "return;", "", "any", "any");
+        takesNothing("swap", "return;", "", "any", "any");
+        takesNothing("same E", "E: return;", "", "reference", "reference");
+        takesNothing("other E", "E: return;", "", "reference", "reference");
+        takesNothing("ifnull E", "E: return;", "", "reference");
+        takesNothing("ifsome E", "E: return;", "", "reference");
+        takesNothing("enter", "null; exit; return;", "", "reference");
+        takesNothing("exit", "return;", "null; enter; ", "reference");
+        takesNothing("throw", "", "", "Throwable");
+        for (String op : "cast A,cast int[],is A,is A[],get A.n,putstatic A.sa,putstatic A.sq,length,virtual void I.i(),special void A.<init>()".split(",")) {
+            takesNothing(op, "return;", "", "reference");
+        }
+        takesNothing("putstatic A.sn", "return;", "", "int");
+        takesNothing("put A.n", "return;", "", "A", "int");
+        takesNothing("put A.o", "return;", "", "A", "Object");
+        takesNothing("element", "return;", "", "array", "int");
+        takesNothing("virtual void A.m(int, A)", "return;", "", "A", "int", "A");
+        takesNothing("call void A.t(A[], int)", "return;", "", "A[]", "int");
+        takesNothing("lambda I void A.u(I, Object)", "return;", "", "I", "Object");
+        takesNothing("setelement", "return;", "", "array", "int", "any");
+        for (String array : new String[] {"int", "A"}) {
+            wrong(23, "goto S; T: @setelement; return; S: push 1; array " + array + "; push 1; load 9; goto T;");
+        }
+        for (String type : new String[] {"int", "A", "Object", "int[]", "A[]"}) {
+            Judged.fault(23, Judged.main(MORE + "class K { static method " + type + " m() { goto S; T: @give; S: load 9; goto T; } }", "return;"));
+        }
+        ThreadJudge x = Judged.of(Judged.main("", "goto S; T: pop; return; S: load 9; goto T;"));
+        Judged.due("taken by 3 all the same", x.load(), 23);
+        wrong(23, "goto S; T: @inc 1 1; pop; return; S: load 9; dup; store 1; goto T;");
+    }
+
+    /** The last of 24 classes is a kind of its own: none of int, NULL, NOTHING, arrays. */
+    private static void lastClass() {
+        StringBuilder classes = new StringBuilder();
+        for (int k = 0; k < 22; k++) {
+            classes.append("class C").append(k).append(" { } ");
+        }
+        classes.append("class Z { static field Z z; static field Z[] q; static field int n; static field Object o; } ");
+        // Z 41, Main 42: then the other way round
+        for (int last = 0; last < 2; last++) {
+            String main = Judged.main("", "null; new Z; new Main; push 1; array Z; push 1; array Main; push 1; array int; push 1; new Z; return;");
+            ThreadJudge x = Judged.loaded(last == 0 ? classes + main : main + " " + classes);
+            int end = x.count(6) - 1;
+            int z = last == 0 ? 41 : 42;
+            int m = last == 0 ? 42 : 19;
+            int[] due = {-3, z, m, -5, -5, -5, -2, z};
+            for (int k = 0; k < due.length; k++) {
+                for (int c = -5; c < 43; c++) {
+                    Judged.due("place " + k + ", kind " + c, x.kind(end, 10 + k, c), c == -1 ? -1 : c == due[k] ? 1 : 0);
+                }
+                Judged.due("no kind 43", x.kind(end, 10 + k, 43), -1);
+            }
+            for (int k = 0; k < 10; k++) {
+                for (int c = -5; c < 43; c++) {
+                    Judged.due("local " + k + ", kind " + c, x.kind(end, k, c), c == -1 ? -1 : c == -4 ? 1 : 0);
+                }
+            }
+            String head = last == 0 ? classes.toString() : "";
+            String tail = last == 0 ? "" : " " + classes;
+            String[] right = {"new Z; putstatic Z.z;", "null; putstatic Z.z;", "push 1; array Z; putstatic Z.q;", "push 1; array Z; putstatic Z.o;", "new Z; putstatic Z.o;",
+                "push 1; putstatic Z.n;", "push 1; array Z; push 0; element; putstatic Z.z;", "push 1; array Main; putstatic Z.o;", "new Main; putstatic Z.o;", "null; throw;"};
+            String[] wrong = {"push 1; @putstatic Z.z;", "new Z; @putstatic Z.n;", "new Main; @putstatic Z.n;", "push 1; array Z; @putstatic Z.z;", "new Z; @putstatic Z.q;", "push 1; array Main; @putstatic Z.q;",
+                "push 1; array Object; @putstatic Z.q;", "push 1; array int; @putstatic Z.q;", "push 1; array Main; push 0; element; @putstatic Z.z;", "new Main; @neg;", "new Z; @neg;", "new Z; @throw;", "new Main; push 0; @element;"};
+            for (String lines : right) {
+                Judged.fine(head + Judged.main("", lines + " return;") + tail);
+            }
+            for (String lines : wrong) {
+                Judged.fault(23, head + Judged.main("", lines + " return;") + tail);
+            }
+        }
     }
 
     /** "45: the value int for int[], else a reference" */

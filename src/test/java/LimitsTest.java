@@ -91,7 +91,7 @@ public final class LimitsTest {
         Judged.due("just 300", x.analyse(1, 300), 300);
         Judged.due("not degraded", x.count(16), 0);
         askAll(x);
-        Judged.due("299 granted", x.analyse(1, 299), 6);
+        Judged.due("299 granted", Judged.loaded(text).analyse(1, 299), 6);
     }
 
     private static void code() {
@@ -139,9 +139,9 @@ public final class LimitsTest {
         String lines = "new T; virtual void Thread.start(); new U; virtual void Thread.start(); ";
         String ends = "string \"a\"; enter; string \"b\"; enter; string \"b\"; exit; string \"a\"; virtual void Object.wait(); string \"a\"; exit; push 1; putstatic Main.n; return;";
         // T's run 14 .., U's run 14 + 11 + 8 * 113 .., main's
-        String fill = times("static method void f#() { " + times("null; pop; ", 56) + "return; } ", 8);
+        String fill = times("static method void f#() { " + times("null;pop;", 56) + "return; } ", 8);
         int main = 1000 - 22 - 8 * 113;
-        String text = "class T extends Thread { " + run + "class F { " + fill + "} class U extends Thread { " + run + "class Main { static field int n; static method void main() { " + lines + "goto Z; Z: " + times("push 1; pop; ", (main - 18) / 2) + ends + " } }";
+        String text = "class T extends Thread { " + run + "class F { " + fill + "} class U extends Thread { " + run + "class Main { static field int n; static method void main() { " + lines + "goto Z; Z: " + times("null;pop;", (main - 18) / 2) + ends + " } }";
         ThreadJudge x = Judged.loaded(text);
         Judged.due("instructions", x.count(6), 1014);
         x.analyse(1, 300);
@@ -163,6 +163,8 @@ public final class LimitsTest {
         Judged.due("rash", x.waits(0, 1), 2);
         Judged.due("the last with the first", x.parallel(1013, 14), 1);
         Judged.due("the last may hold nothing", x.held(1013, false, -1), 0);
+        x = Judged.loaded(text);
+        x.analyse(1, 300);
         x.begin();
         for (int t = 0; t < 3; t++) {
             for (int k = 0; k < 90 && x.step(t) == 1; k++) {
@@ -174,9 +176,9 @@ public final class LimitsTest {
         Judged.due("of T", x.clash(0, 0), writes[0]);
         Judged.due("and U", x.clash(0, 1), writes[1]);
         Judged.yes("foreseen", x.foreseen());
-        ThreadJudge y = Judged.loaded(text.replace("virtual void Object.wait();", "virtual void Object.notify();"));
-        y.analyse(0, 300);
         for (int draw = 0; draw < 3; draw++) {
+            ThreadJudge y = Judged.loaded(text.replace("virtual void Object.wait();", "virtual void Object.notify();"));
+            y.analyse(0, 300);
             y.begin();
             // main to its end, then U, then T
             for (int t : draw == 0 ? new int[] {0, 2, 1} : draw == 1 ? new int[] {0, 1, 2} : new int[] {0, 2}) {
@@ -207,15 +209,16 @@ public final class LimitsTest {
 
     private static void threads() {
         String full = times("getstatic Main.o; ", 8);
-        ThreadJudge x = Judged.loaded(Judged.main("class T extends Thread { method void run() { push 28; call void T.d(int); return; } static method void d(int) { getstatic Main.o; store 1; load 1; enter; load 0; ifle L; load 0; push 1; sub; call void T.d(int); M: load 1; exit; return; L: "
+        String text = Judged.main("class T extends Thread { method void run() { push 28; call void T.d(int); return; } static method void d(int) { getstatic Main.o; store 1; load 1; enter; load 0; ifle L; load 0; push 1; sub; call void T.d(int); M: load 1; exit; return; L: "
             + full + "goto K; K: virtual void Object.wait(); virtual void Object.notify(); pop; pop; pop; pop; pop; pop; goto M; } }",
-            "new Object; putstatic Main.o; L: new T; virtual void Thread.start(); getstatic Main.n; push 1; add; dup; putstatic Main.n; push 11; cmplt L; N: getstatic Main.o; enter; getstatic Main.o; virtual void Object.notifyAll(); getstatic Main.o; exit; goto N;").replace("class Main {", "class Main { static field Object o; static field int n;"));
-        x.analyse(0, 300);
+            "new Object; putstatic Main.o; L: new T; virtual void Thread.start(); getstatic Main.n; push 1; add; dup; putstatic Main.n; push 11; cmplt L; N: getstatic Main.o; enter; getstatic Main.o; virtual void Object.notifyAll(); getstatic Main.o; exit; goto N;").replace("class Main {", "class Main { static field Object o; static field int n;");
         for (int draw = 0; draw < 6; draw++) {
+            ThreadJudge x = Judged.loaded(text);
+            x.analyse(0, 300);
             x.begin();
             for (int k = 0; k < 12; k++) {
                 x.run(2000, draw * 31 + k);
-                for (int t = 0; t < x.count(19); t++) {
+                for (int t = 0; k % 3 == 2 && t < 12; t++) {
                     for (int what = 0; what < 5; what++) {
                         x.state(t, what);
                     }

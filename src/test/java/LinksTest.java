@@ -4,6 +4,7 @@ public final class LinksTest {
 
     public static void main(String[] args) {
         eachExtendsObject();
+        classesOfTheLibrary();
         below();
         arraysBelow();
         selectTheFirst();
@@ -78,6 +79,40 @@ public final class LinksTest {
             Judged.due("is below Object", x.below(19 + k, 0), 1);
         }
         Judged.due("Object extends nothing", x.classOf(0, 0), -1);
+    }
+
+    /** Classes of the library are told by their names as those of the text are, the first and the last of them too. */
+    private static void classesOfTheLibrary() {
+        String[] names = ("Object Runnable String Class Method Throwable NullPointer Arithmetic Index Cast Store Size Monitor State NoClass NoMethod "
+            + "Thread Out Runtime").split(" ");
+        for (int c = 0; c < names.length; c++) {
+            String name = names[c];
+            boolean isInterface = c == 1;
+            boolean isThrown = c >= 5 && c <= 15;
+            if (isInterface) {
+                ten("class A extends @" + name + " { }");
+                ThreadJudge x = Judged.loaded("class A implements " + name + " { method void run() { return; } }" + MAIN);
+                Judged.due("implements " + name, x.below(19, c), 1);
+                line("@new " + name + "; pop;");
+            } else {
+                ten("class A implements @" + name + " { }");
+                ten("interface I implements @" + name + " { }");
+                ten("interface I extends @" + name + " { }");
+                ThreadJudge x = Judged.loaded("class A extends " + name + " { }" + MAIN);
+                Judged.due("extends " + name, x.classOf(19, 0), c);
+                Judged.due("is below " + name, x.below(19, c), 1);
+                fineLine("new " + name + "; pop;");
+            }
+            ten("class @" + name + " { }");
+            fineLine("null; cast " + name + "; pop; null; is " + name + "; pop; null; cast " + name + "[]; pop; push 1; array " + name + "; pop;");
+            String caught = "S: push 1; pop; E: return; H: pop; ";
+            if (isThrown) {
+                fineLine(caught + "return; catch " + name + " S E H;");
+            } else {
+                line(caught + "return; @catch " + name + " S E H;");
+            }
+            fine("class A { field " + name + " f; static field " + name + "[] g; static method " + name + " m(" + name + ", " + name + "[]) { load 0; give; } }");
+        }
     }
 
     /** "A class is BELOW itself, what it extends, what it implements, and what these are below." */

@@ -36,7 +36,8 @@ public final class ManyTest {
     /** 116 objects in one static field, and those of them that a class fits. */
     private static void objectsInOnePlace() {
         String makes = times("new A; putstatic Main.o; new B; putstatic Main.o; ", 29);
-        ThreadJudge x = of(0, "class A { } class B { } class M { static method void m() { " + makes + "return; } static method void n() { " + makes + "return; } } class Main { static field Object o; static method void main() { call void M.m(); call void M.n(); getstatic Main.o; dup; cast A; pop; cast B; return; } }");
+        String text = "class A { } class B { } class M { static method void m() { " + makes + "return; } static method void n() { " + makes + "return; } } class Main { static field Object o; static method void main() { call void M.m(); call void M.n(); getstatic Main.o; dup; cast A; pop; cast B; return; } }";
+        ThreadJudge x = of(0, text);
         int get = x.count(6) - 6;
         Judged.due("objects", x.count(9), 117);
         Judged.due("all", x.holds(get + 1, 10, -1), 116);
@@ -45,6 +46,7 @@ public final class ManyTest {
             Judged.due("in the field " + k, x.field(0, 1, k), k);
         }
         Judged.due("no more", x.holds(get + 1, 10, 116), -1);
+        x = of(0, text);
         Judged.due("A's", x.holds(get + 3, 11, -1), 58);
         Judged.due("B's", x.holds(get + 5, 10, -1), 58);
         for (int k = 0; k < 58; k++) {
@@ -105,6 +107,7 @@ public final class ManyTest {
         for (int k = 0; k < 116; k += 3) {
             Judged.due("all " + k, x.answered(k), k);
         }
+        x = of(0, text);
         Judged.due("callers", Judged.ask(x, "callers(callees(A)) & A"), 49);
         Judged.due("the last", x.answered(48), 17 + 96);
         Judged.due("from main", Judged.ask(x, "from(main) - main"), 98);
@@ -112,6 +115,7 @@ public final class ManyTest {
         Judged.due("b", x.answered(1), 114);
         Judged.due("a", x.answered(0), 113);
         Judged.due("main", x.answered(2), 115);
+        x = of(0, text);
         for (int k = 0; k < 49; k += 4) {
             Judged.due("way to b " + k, x.way(18 + 2 * k, -1), 2);
             Judged.due("first", x.way(18 + 2 * k, 0), x.method(115, 3) + k);

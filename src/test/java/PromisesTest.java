@@ -30,6 +30,7 @@ public final class PromisesTest {
         holds();
         object();
         field();
+        fieldOfAnyMake();
         calls();
         reached();
         begins();
@@ -501,6 +502,33 @@ public final class PromisesTest {
                 Judged.due("field " + f + " of " + o, x.field(o, f, -1), many[o][f + 7]);
                 Judged.due("first of " + f + " of " + o, x.field(o, f, 0), many[o][f + 7] == 0 ? -1 : o == 2 ? 0 : 4);
             }
+        }
+    }
+
+    /** "in a field of an object (f a field that is not static ..), or of a static field (o is not looked at then)": by static alone, whatever else a field is. */
+    private static void fieldOfAnyMake() {
+        ThreadJudge x = Judged.loaded(Judged.main("class K { volatile field Object v; final field Object f; static volatile field Object w; static final field Object g; "
+            + "method void <init>() { load 0; new K; put K.f; return; } static method void <clinit>() { new Object; putstatic K.g; return; } } ",
+            "new K; dup; special void K.<init>(); dup; string \"v\"; put K.v; putstatic K.w; return;"));
+        x.analyse(0, 300);
+        // fields: v 1, f 2, w 3, g 4; objects: the K of <init>, the Object of <clinit>, the K of main, the string
+        for (int o = 0; o < 4; o++) {
+            int site = x.object(o, 0);
+            boolean main = x.instruction(site, 1) == x.count(5) - 1 && site < 2000;
+            Judged.due("volatile", x.field(o, 1, -1), main ? 1 : 0);
+            Judged.due("final", x.field(o, 2, -1), main ? 1 : 0);
+            Judged.due("the string", x.field(o, 1, 0), main ? 3 : -1);
+            Judged.due("the K of <init>", x.field(o, 2, 0), main ? 0 : -1);
+        }
+        for (int o : new int[] {-1, 0, 3, 4, 1000}) {
+            Judged.due("static volatile", x.field(o, 3, -1), 1);
+            Judged.due("static volatile, first", x.field(o, 3, 0), 2);
+            Judged.due("static final", x.field(o, 4, -1), 1);
+            Judged.due("static final, first", x.field(o, 4, 0), 1);
+        }
+        for (int o : new int[] {-1, x.count(9), 1000}) {
+            Judged.due("volatile of no object", x.field(o, 1, -1), -1);
+            Judged.due("final of no object", x.field(o, 2, -1), -1);
         }
     }
 

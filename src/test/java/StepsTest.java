@@ -323,10 +323,9 @@ public final class StepsTest {
         // MAIN's own LOCK: its CLASS would be one thing too many
         for (int more = 0; more < 2; more++) {
             y = begun("class Main { static method void <clinit>() { push " + (399 + more) + "; store 1; L: new Object; pop; inc 1 -1; load 1; ifgt L; return; } static synchronized method void main() { push 1; return; } }");
-            while (y.state(0, 1) == 2) {
-                y.step(0);
-            }
-            int done = y.count(17);
+            int done = 2 + 5 * (399 + more) + 1;
+            Judged.due("steps of <clinit>", y.run(done - 5, 0) + y.run(5, 0), done);
+            Judged.due("<clinit> is ended", y.state(0, 1), 1);
             Judged.due("things of <clinit>", y.count(18), 399 + more);
             Judged.due("enters its LOCK", y.step(0), 1 - more);
             Judged.due("full by the CLASS", y.count(24), more);

@@ -19,6 +19,7 @@ public final class TokensTest {
         stringWithoutEnd();
         letterBehindNumber();
         reserved();
+        whatDoesNotStay();
         Judged.end();
     }
 
@@ -259,6 +260,39 @@ public final class TokensTest {
         }
         for (String word : "main run wait named all reached native racing locking starting callers callees into from true null_ if else text line label name type".split(" ")) {
             Judged.fine("class " + word + " { field int " + word + "; method void " + word + "(int) { " + word + ": goto " + word + "; } }" + MAIN);
+        }
+    }
+
+    /** Promise 2: of the last twenty bytes "the first n (0 .. 20) stay": what does not stay is no byte of any token. */
+    private static void whatDoesNotStay() {
+        String head = "class Main { static method void main() { ";
+        cut(1, head + "string @\"ab", "\"; return; } }");
+        cut(2, head + "string \"ab\"", "c\"; return; } }");
+        cut(2, head + "push 21474836", "48; return; } }");
+        cut(2, head + "push 1", "a; return; } }");
+        cut(1, head + "push @-", "1; return; } }");
+        cut(2, head + "a23456789012345678901234", "5: return; } }");
+        cut(2, head + "push 1; return; }", " }");
+        cut(2, "@cla", "ss A { }");
+        cut(2, "class", " A { }");
+        cut(13, MAIN.replace("main", "maim"), "% no token");
+        cut(13, "# a remark", "\n%");
+    }
+
+    /** A text of which the first part alone stays has a fault at @ there, or at its end. */
+    private static void cut(int number, String marked, String more) {
+        int place = marked.indexOf('@');
+        String text = marked.replace("@", "");
+        for (int pad = 40; pad < 60; pad++) {
+            String all = text + more + " ".repeat(20);
+            String fed = " ".repeat(pad) + all;
+            int length = pad + text.length();
+            ThreadJudge x = Judged.of(fed);
+            for (int n = fed.length(); n > length; n = Math.max(length, n - 20)) {
+                Judged.due("end", x.end(Math.max(0, 20 - (n - length))), Math.max(length, n - 20));
+            }
+            Judged.due("load of " + text, x.load(), number);
+            Judged.due("place of " + text, x.count(1), place < 0 ? length : pad + place);
         }
     }
 }
