@@ -33,6 +33,7 @@ public final class AgainTest {
         hooksAgain();
         knotsAgain();
         onceAgain();
+        parallelAgain();
         Judged.end();
     }
 
@@ -139,6 +140,46 @@ public final class AgainTest {
                 x.analyse(0, 300);
                 Judged.due("behind it " + text, x.count(13), ab && ba ? 2 : 0);
                 Judged.due("first", x.knot(0, 0), ab && ba ? 17 : -1);
+            }
+        }
+    }
+
+    /** What was before, behind, or gone through in a text analysed before is so no more: texts of the same instructions but for some that lead elsewhere. */
+    private static void parallelAgain() {
+        StringBuilder many = new StringBuilder();
+        StringBuilder calls = new StringBuilder();
+        for (int k = 0; k < 12; k++) {
+            many.append("static method void a").append(k).append("() { return; } ");
+            calls.append("call void A.a").append(k).append("(); ");
+        }
+        String classes = "class T extends Thread { static field int n; method void run() { getstatic T.n; pop; return; } } class A { " + many + "static method void m() { push 1; putstatic T.n; return; } } ";
+        String[] mains = new String[16];
+        for (int k = 0; k < mains.length; k++) {
+            String m = "call void A.m(); ";
+            String a = "call void A.a0(); ";
+            mains[k] = calls + ((k & 1) != 0 ? m : a) + "new T; dup; store 0; virtual void Thread.start(); " + ((k & 2) != 0 ? m : a)
+                + ((k & 8) != 0 ? "push 1; ifeq L; " : "push 1; pop; ") + "load 0; virtual void Thread.join(); L: " + ((k & 4) != 0 ? m : a) + "return;";
+        }
+        for (int before = 0; before < mains.length; before++) {
+            for (int k = 0; k < mains.length; k++) {
+                ThreadJudge x = Judged.loaded(Judged.main(classes, mains[before]));
+                x.analyse(0, 300);
+                x.clear();
+                Judged.feed(x, Judged.main(classes, mains[k]));
+                Judged.due("load", x.load(), 0);
+                x.analyse(0, 300);
+                // run's 14 .., m's behind those of a0 .. a11, main's
+                int m = 14 + 3 + 12;
+                boolean meets = (k & 2) != 0 || (k & 12) == 12 || (k & 5) == 5;
+                Judged.due("m's with run's, of " + k + " behind " + before, x.parallel(m + 1, 14), meets ? 1 : 0);
+                Judged.due("races", x.count(12), meets ? 1 : 0);
+                int main = m + 3;
+                int size = x.count(6) - main;
+                for (int i = 0; i < size; i++) {
+                    boolean ahead = i < 12 + 5;
+                    boolean behind = (k & 8) == 0 && i >= size - 2;
+                    Judged.due("main's " + i + " of " + k + " behind " + before, x.parallel(14, main + i), ahead || behind ? 0 : 1);
+                }
             }
         }
     }

@@ -7,6 +7,7 @@ public final class LimitsTest {
         code();
         hooks();
         lastInstructions();
+        lastStringsClassesMethods();
         things();
         threads();
         Judged.end();
@@ -191,6 +192,40 @@ public final class LimitsTest {
             Judged.due("with main", y.clash(0, 1), writes[2]);
             Judged.yes("foreseen", y.foreseen());
         }
+    }
+
+    /** The last of 32 STRINGS, of 43 CLASSES, of 117 METHODS, and the first ones, are one thing each, however often they come to be. */
+    private static void lastStringsClassesMethods() {
+        StringBuilder strings = new StringBuilder();
+        for (int k = 0; k < 29; k++) {
+            strings.append("string \"s").append(k).append("\"; pop; ");
+        }
+        String all = strings + "string \"Object\"; call Class Class.named(String); pop; string \"Z\"; call Class Class.named(String); dup; string \"m98\"; virtual Method Class.find(String); dup; null; virtual Object Method.invoke(Object); pop; pop; string \"m98\"; virtual Method Class.find(String); pop; ";
+        String text = "class Main { static method void main() { push 0; store 1; L: " + all + "inc 1 1; load 1; push 2; cmplt L; return; } } " + times("class C# { } ", 22)
+            + "class Z { " + times("static method void m#() { push #; call void Out.print(int); return; } ", 99) + "}";
+        ThreadJudge x = Judged.loaded(text);
+        Judged.due("strings", x.count(7), 32);
+        Judged.due("classes", x.count(3), 43);
+        Judged.due("methods", x.count(5), 117);
+        x.analyse(2, 300);
+        x.begin();
+        x.run(2000, 1);
+        Judged.due("ended", x.state(0, 0), 4);
+        Judged.due("things", x.count(18), 32 + 2 + 1);
+        boolean[] told = new boolean[5000];
+        for (int n = 0; n < x.count(18); n++) {
+            Judged.yes("each once", !told[x.thing(n, 1)]);
+            told[x.thing(n, 1)] = true;
+        }
+        for (int s = 0; s < 32; s++) {
+            Judged.yes("STRING " + s, told[2000 + s]);
+        }
+        Judged.yes("the first CLASS", told[3000]);
+        Judged.yes("the last CLASS", told[3042]);
+        Judged.yes("the last METHOD", told[4116]);
+        Judged.due("said", x.count(20), 2);
+        Judged.due("by the last METHOD", x.said(0) * 100 + x.said(1), 9898);
+        Judged.yes("foreseen", x.foreseen());
     }
 
     private static void things() {

@@ -734,5 +734,18 @@ public final class LinksTest {
         x.begin();
         Judged.due("MAIN is C's", x.state(0, 3), 17);
         Judged.due("so C begins, B does not", x.count(23), 2);
+        // nor of what it implements; the first class that has it counts, not the first that is below such a one
+        String own = "{ static method void main() { return; } }";
+        String[] texts = {"class B extends D { } class C " + own + " class D " + own, "class B implements I { } class C " + own + " interface I " + own,
+            "class B implements I { } class C " + own + " excluded interface I " + own, "abstract class B extends D { } interface J implements I { } abstract class C " + own + " class D " + own + " interface I " + own};
+        int[] of = {20, 20, 20, 21};
+        for (int k = 0; k < texts.length; k++) {
+            ThreadJudge y = Judged.loaded(texts[k]);
+            y.begin();
+            Judged.due("MAIN of " + texts[k], y.method(y.state(0, 3), 0), of[k]);
+        }
+        Judged.fault(13, "class B implements I { } excluded interface I " + own);
+        Judged.fault(13, "class B extends D { } excluded class D " + own);
+        Judged.fine("interface I " + own);
     }
 }

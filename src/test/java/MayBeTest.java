@@ -32,6 +32,7 @@ public final class MayBeTest {
         uncaughtTakesWhatIsLetGo();
         noneSelected();
         excluded();
+        excludedAlone();
         degraded();
         notComeTo();
         classOfLock();
@@ -805,6 +806,33 @@ public final class MayBeTest {
         Judged.due("two", x.count(15), 2);
         Judged.yes("in order", x.unresolved(0) + 1 == x.unresolved(1));
         Judged.due("- 1", x.unresolved(-1), -1);
+    }
+
+    /** "An 'excluded' class is not looked into: its methods with lines make no instances": its own, not what it is below, nor what is below it */
+    private static void excludedAlone() {
+        String text = "class D { static field Object o; static method void <clinit>() { new Cast; throw; } method void m() { load 0; putstatic D.o; return; } method void <init>() { return; } static method void s() { return; } } "
+            + "interface J { method void j() { return; } } excluded class E extends D implements J { } class F extends E { method void f() { return; } static method void <clinit>() { return; } } excluded class G extends F { method void m() { return; } } ";
+        // D 19: <clinit> 17, m 18, <init> 19, s 20; J 20: j 21; E 21; F 22: f 22, <clinit> 23; G 23: m 24
+        String[] lines = {"new E; pop;", "new E; virtual void D.m();", "new E; special void D.<init>();", "new E; virtual void J.j();", "call void E.s();", "new F; virtual void F.f();", "new F; pop;", "new G; virtual void F.f();", "new G; pop;",
+            "new G; virtual void D.m();", "string \"E\"; call Class Class.named(String); virtual Object Class.newInstance(); pop;",
+            "string \"E\"; call Class Class.named(String); string \"m\"; virtual Method Class.find(String); new E; virtual Object Method.invoke(Object); pop;", "lambda Runnable void E.s(); virtual void Runnable.run();"};
+        String[] due = {"17", "17 18", "17 19", "17 21", "17 20", "17 22 23", "17 23", "17 22 23", "17 23", "17 23", "17 19", "17 18", "20"};
+        for (int k = 0; k < lines.length; k++) {
+            for (int policy = 0; policy < 4; policy++) {
+                ThreadJudge x = of(policy, Judged.main(text, "A: " + lines[k] + " B: return; H: return; catch Cast A B H;"));
+                StringBuilder all = new StringBuilder();
+                for (int m = 17; m < 25; m++) {
+                    all.append(x.reached(m, 0) > 0 ? " " + m : "");
+                }
+                same("instances of " + lines[k], all.toString(), " " + due[k]);
+                Judged.due("unresolved of " + lines[k], x.count(15), k == 9 ? 1 : 0);
+                String thrown = lines[k].startsWith("lambda") ? "" : x.method(17, 3) + " ";
+                same("Cast that comes: " + lines[k], at(x, x.count(6) - 1, 10), thrown + (lines[k].contains("invoke") ? "5009 " : ""));
+            }
+        }
+        ThreadJudge x = of(0, Judged.main(text, "new E; virtual void D.m(); getstatic D.o; pop; return;"));
+        same("the receiver is of the class that is not looked into", at(x, x.method(18, 3), 0), (x.count(6) - 5) + " ");
+        same("and comes into the field", at(x, x.count(6) - 2, 10), (x.count(6) - 5) + " ");
     }
 
     /** "analyse() takes another policy than it was told, namely 0, and is DEGRADED, if by the one told there would be more instances than are granted" .. "(Told 0, it goes on all the same, and is DEGRADED.)" */

@@ -11,6 +11,7 @@ public final class MonitorsTest {
         callsWantTheirLocksAlone();
         heldByManyObjects();
         wantedByManyObjects();
+        wantedByTheNativeWait();
         Judged.end();
     }
 
@@ -42,6 +43,43 @@ public final class MonitorsTest {
                 Judged.due("A.s", x.held(15, false, -1), 0);
                 Judged.due("B.s", x.held(17, false, -1), calls ? 1 : 0);
                 Judged.due("B.s surely", x.held(17, true, -1), calls ? 1 : 0);
+            }
+        }
+    }
+
+    /** "or calls the native wait of p": of those receivers from which the native one is selected, not of those that have a wait() of their own */
+    private static void wantedByTheNativeWait() {
+        String classes = "class A { method void wait() { return; } } interface W { abstract method void wait(); } class X { static field Object x; static field Object s; static method void none() { return; } "
+            + "static method void one() { getstatic X.x; enter; getstatic X.s; @ null; exit; return; } "
+            + "static method void two() { getstatic X.s; enter; getstatic X.x; enter; null; exit; null; exit; return; } } ";
+        String[] makes = {"new Object;", "new A;", "lambda W void X.none();"};
+        String[] calls = {"virtual void Object.wait();", "call void X.t(Object);"};
+        for (int k = 1; k < 8; k++) {
+            StringBuilder sets = new StringBuilder("new Object; putstatic X.x; ");
+            for (int n = 0; n < 3; n++) {
+                sets.append((k >> n & 1) != 0 ? makes[n] + " putstatic X.s; " : "");
+            }
+            for (String call : calls) {
+                String text = Judged.main(classes.replace("@", call).replace("void none()", "void t(Object) { load 0; virtual void Object.wait(); return; } static method void none()"),
+                    sets + "new Thread; virtual void Thread.start(); call void X.one(); call void X.two(); return;");
+                boolean here = call.equals(calls[0]);
+                ThreadJudge x = of(0, text);
+                // X.x 2's object is the first that main makes; those of X.s follow
+                boolean some = (k & 1) != 0;
+                Judged.due("knots of " + k + " by " + call, x.count(13), some ? 2 : 0);
+                if (some) {
+                    int wait = x.method(x.classOf(21, 4) + (here ? 2 : 0), 3);
+                    while (x.instruction(wait, 0) != 49 || x.instruction(wait, 2) != 1) {
+                        wait++;
+                    }
+                    Judged.due("where it waits", x.knot(0, 0), wait);
+                    int one = x.field(0, 1, 0);
+                    int first = x.field(0, 2, 0);
+                    Judged.due("held", x.knot(0, 1), one);
+                    Judged.due("the Object is wanted", x.knot(0, 2), first);
+                    Judged.due("the other way round", x.knot(1, 1) * 1000 + x.knot(1, 2), first * 1000 + one);
+                    Judged.due("no more", x.knot(2, 0), -1);
+                }
             }
         }
     }

@@ -193,7 +193,8 @@ public final class StepsTest {
 
     /** "THINGS .. 400 at most" .. "where there would be more of them, or of things, the run is OVER, and FULL" */
     private static void fourHundredThings() {
-        String k = "class K { static synchronized method void s() { return; } method void <init>(int) { return; } method void m() { return; } } ";
+        String k = "class K { static synchronized method void s() { return; } method void <init>(int) { return; } method void m() { return; } } "
+            + "class G { static field Object o; static method void g() { return; } } ";
         makes(k, "", 0, "new K; pop;", true);
         makes(k, "", 0, "push 2; array int; pop;", true);
         makes(k, "", 0, "lambda Runnable void Main.main(); pop;", true);
@@ -211,6 +212,12 @@ public final class StepsTest {
         makes(k, "", 0, "A: null; throw; B: null; H: pop; return; catch Throwable A B H;", true);
         makes(k, "new State; store 1;", 1, "A: load 1; throw; B: null; H: pop; return; catch Throwable A B H;", false);
         makes(k, "new Thread; store 1;", 1, "load 1; virtual void Thread.start();", false);
+        makes(k, "", 0, "call void G.g();", false);
+        makes(k, "new K; store 1;", 1, "load 1; virtual void K.m();", false);
+        makes(k, "", 0, "push 4; call void Out.print(int);", false);
+        makes(k, "lambda Runnable void G.g(); store 1;", 1, "load 1; virtual void Runnable.run();", false);
+        makes(k, "string \"G\"; call Class Class.named(String); string \"g\"; virtual Method Class.find(String); store 1;", 4, "load 1; null; virtual Object Method.invoke(Object); pop;", false);
+        makes(k, "", 0, "getstatic G.o; pop; null; putstatic G.o;", false);
         // a LOCK that is a receiver's is a thing already
         String n = "class N { synchronized method void n() { return; } synchronized method Object o() { load 0; give; } } ";
         makes(n, "new N; store 1;", 1, "load 1; virtual void N.n();", false);
@@ -451,6 +458,25 @@ public final class StepsTest {
         Judged.due("then s", x.state(0, 3), 18);
         Judged.due("its LOCK", x.thing(0, 1), 3019);
         Judged.due("entered", x.thing(0, 3), 1);
+        // a lambda's method holds the LOCK of a class that has not begun: what lets it begin does not wait for that
+        String k = "class S { static method void <clinit>() { return; } } class K extends S { @static synchronized method void s() { return; } static synchronized method void m() { L: goto L; } } ";
+        for (int own = 0; own < 2; own++) {
+            ThreadJudge y = begun(k.replace("@", own == 1 ? "static method void <clinit>() { return; } " : ""), "new Thread; dup; lambda Runnable void K.m(); special void Thread.<init>(Runnable); virtual void Thread.start(); call void K.s(); return;");
+            steps(y, 0, 4 + 4 + 1);
+            steps(y, 1, 9);
+            int lock = y.count(18) - 1;
+            Judged.due("the LOCK", y.thing(lock, 1), 3020);
+            Judged.due("is the other thread's", y.thing(lock, 4), 1);
+            Judged.due("can go on", y.state(0, 0), 0);
+            int began = y.count(23);
+            steps(y, 0, 1);
+            Judged.due("frames of <clinit>", y.state(0, 1), 2 + own);
+            Judged.due("K and S begin", y.count(23) - began, 2);
+            steps(y, 0, 1 + own);
+            Judged.due("then it waits for the LOCK", y.state(0, 0), 1);
+            Judged.due("which is", y.state(0, 4), lock);
+            Judged.due("and nothing is done", y.step(0), 0);
+        }
     }
 
     /** "Ended, also by what it lets go, the class has begun." */
@@ -1229,6 +1255,16 @@ public final class StepsTest {
         x.run(2000, 1);
         Judged.due("threads", x.count(19), 12);
         Judged.due("not full", x.count(24), 0);
+        for (int more = 0; more < 3; more++) {
+            for (int started = 1; started < 6; started++) {
+                int others = 11 - started + more - 1;
+                x = begun("class T extends Thread { method void run() { return; } } ", "push " + started + "; store 1; L: new T; dup; call void Runtime.hook(Thread); virtual void Thread.start(); inc 1 -1; load 1; ifgt L; push "
+                    + others + "; store 1; M: new T; call void Runtime.hook(Thread); inc 1 -1; load 1; ifgt M; return;");
+                x.run(2000, 1);
+                Judged.due("threads", x.count(19), more < 2 ? 1 + started + others : 1 + started);
+                Judged.due("full", x.count(24), more < 2 ? 0 : 1);
+            }
+        }
     }
 
     // ---- natives
