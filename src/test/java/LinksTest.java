@@ -58,6 +58,14 @@ public final class LinksTest {
         Judged.fine(text + MAIN);
     }
 
+    private static String numbered(String what, int n) {
+        StringBuilder all = new StringBuilder();
+        for (int k = 0; k < n; k++) {
+            all.append(what.replace("#", "" + k));
+        }
+        return all.toString();
+    }
+
     private static final String MORE = "abstract class Abs { abstract method void a(); } interface I { abstract method void i(); static method void si() { return; } static field int z; } "
         + "class A implements I { field int f; static field int s; field A[] arr; method void m() { return; } static method void t() { return; } method void a() { return; } method int g(int) { push 1; give; } method void i() { return; } } "
         + "class B extends A { static field int f2; } ";
@@ -453,6 +461,10 @@ public final class LinksTest {
         fine("class A { method void <init>(int) { return; } } class B extends A { method void <init>(int) { return; } }");
         eleven("class C extends B { } class B extends A { method void <init>() { return; } } class A { method int @<init>() { push 1; give; } }");
         eleven("class C extends B { } class B extends A { method int @<x>() { push 1; give; } } class A { method void <x>() { return; } }");
+        // behind many other methods
+        String many = "class Z { " + numbered("method void z#(int) { return; } ", 60) + "} ";
+        eleven(many + i + "interface J { abstract method int m(int); } class @C implements I, J { }");
+        eleven(many + "class A { method int m() { push 1; give; } } class B { method void y() { return; } } interface I { method void m() { return; } } class @C extends A implements I { }");
         // two of one class are another fault, and stand elsewhere
         eleven("class C extends A { } class A { method int f() { push 1; give; } method void @f() { return; } }");
         eleven("class C extends A { } class A { method void f() { return; } method int @f() { push 1; give; } method void f() { return; } }");
@@ -609,6 +621,26 @@ public final class LinksTest {
             Judged.fault(12, Judged.main(beside, op + " return;"));
         }
         Judged.fine(Judged.main(beside, "null; virtual void A.q(); null; virtual void Q.q(); null; virtual void P.p(); call void R.t(); return;"));
+        // of one name and parameters each class may have one that gives something else
+        String[] types = {"int", "void", "K0", "K0[]", "int[]"};
+        StringBuilder unlike = new StringBuilder();
+        for (int k = 0; k < types.length; k++) {
+            String gives = k == 0 ? "push 1; give;" : k == 1 ? "return;" : "null; give;";
+            unlike.append("class K" + k + " { method " + types[k] + " f(int) { " + gives + " } static method " + types[types.length - 1 - k] + " s() { " + (k == 4 ? "push 1; give;" : k == 3 ? "return;" : "null; give;") + " } } ");
+        }
+        for (int k = 0; k < types.length; k++) {
+            for (int j = 0; j < types.length; j++) {
+                String call = "null; push 1; @virtual " + types[j] + " K" + k + ".f(int); return;";
+                String fixed = "@call " + types[types.length - 1 - j] + " K" + k + ".s(); return;";
+                if (k == j) {
+                    Judged.fine(Judged.main(unlike.toString(), call.replace("@", "")));
+                    Judged.fine(Judged.main(unlike.toString(), fixed.replace("@", "")));
+                } else {
+                    Judged.fault(12, Judged.main(unlike.toString(), call));
+                    Judged.fault(12, Judged.main(unlike.toString(), fixed));
+                }
+            }
+        }
         // what a class above an interface has is not found from it, nor what is below
         line("null; @virtual void I.m();");
         line("null; @virtual void Object.m();");

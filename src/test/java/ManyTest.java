@@ -16,6 +16,10 @@ public final class ManyTest {
         givenAndLetGoOfMany();
         stringsClassesMethods();
         fourThousand();
+        escapesOfMany();
+        heldByManyInstances();
+        onceByMany();
+        behindManyCatches();
         Judged.end();
     }
 
@@ -86,6 +90,89 @@ public final class ManyTest {
         Judged.due("without contexts", x.count(9), 58 + 8 + 1 + 4 + 4);
         Judged.due("by policy 0", x.object(0, 1), -1);
         Judged.due("by policy 3 there is one context of m", x.analyse(3, 300) * 10 + x.count(16), 20);
+    }
+
+    /** "An object ESCAPES: what a static field holds, what is started": each of 470 objects, by these alone. */
+    private static void escapesOfMany() {
+        String start = "class T extends Thread { method void run() { return; } } class A { method void m() { " + times("new T; virtual void Thread.start(); ", 58) + "return; } } " + Judged.main("", times("new A; virtual void A.m(); ", 8) + "return;");
+        String hold = "class A { static field Object o; method void m() { " + times("new Object; putstatic A.o; ", 58) + "return; } } " + Judged.main("", times("new A; virtual void A.m(); ", 8) + "return;");
+        for (String text : new String[] {start, hold}) {
+            boolean starts = text.equals(start);
+            for (int last = 0; last < 2; last++) {
+                ThreadJudge x = of(2, text);
+                int n = x.count(9);
+                Judged.due("objects", n, 464 + 8 + (starts ? 2 : 1));
+                Judged.due("threads", x.count(10), starts ? 465 : 1);
+                // half of them by each object that is asked
+                for (int o = last; o < n; o += 2) {
+                    Judged.due("escapes: " + o, x.object(o, 4), o < 464 ? 1 : 0);
+                }
+            }
+        }
+    }
+
+    /** "all instances of its method together": more than fifty of them, in the order of objects */
+    private static void heldByManyInstances() {
+        StringBuilder calls = new StringBuilder();
+        for (int k = 0; k < 57; k++) {
+            calls.append(k % 3 == 0 ? "new A; " : k % 3 == 1 ? "new B; " : "null; ").append("call void M.m(Object); ");
+        }
+        // 14 enter 15 .. of m, then main's
+        ThreadJudge x = of(1, "class A { } class B { } class M { static method void m(Object) { load 0; enter; null; exit; return; } } " + Judged.main("", calls + "return;"));
+        int main = x.method(18, 3);
+        Judged.due("instances", x.reached(17, 0), 57);
+        Judged.due("all together", x.holds(15, 10, -1), 19 + 19);
+        for (int k = 0; k < 38; k++) {
+            int object = x.holds(15, 10, k);
+            Judged.due("k-th", object, k);
+            Judged.due("site", x.object(object, 0), main + (k / 2 * 3 + k % 2) * 2);
+        }
+        Judged.due("may be held", x.held(16, false, -1), 38);
+        Judged.due("surely in all", x.held(16, true, -1), 0);
+        x = of(1, "class M { static method void m() { return; } } " + Judged.main("", "string \"a\"; enter; " + times("call void M.m(); ", 50) + "null; exit; return;"));
+        Judged.due("surely in all of fifty", x.held(14, true, -1), 1);
+        x = of(1, "class M { static method void m() { return; } } " + Judged.main("", "call void M.m(); string \"a\"; enter; " + times("call void M.m(); ", 50) + "null; exit; return;"));
+        Judged.due("not in the first", x.held(14, true, -1), 0);
+        x = of(1, "class M { static method void m() { return; } } " + Judged.main("", "string \"a\"; enter; " + times("call void M.m(); ", 50) + "null; exit; call void M.m(); return;"));
+        Judged.due("not in the last", x.held(14, true, -1), 0);
+    }
+
+    /** "another one that just one instruction .. calls or starts, if that is ONCE. (The least such.)": by rows of many, whichever way they are numbered */
+    private static void onceByMany() {
+        for (int way = 0; way < 2; way++) {
+            StringBuilder all = new StringBuilder();
+            for (int k = 0; k < 90; k++) {
+                int next = way == 0 ? k + 1 : k - 1;
+                all.append("static method void m" + k + "() { " + (next < 0 || next > 89 ? "" : "call void A.m" + next + "(); ") + "return; } ");
+            }
+            String first = "call void A.m" + (way == 0 ? 0 : 89) + "(); ";
+            ThreadJudge x = of(0, "class A { " + all + "} " + Judged.main("", first + "return;"));
+            ThreadJudge y = of(0, "class A { " + all + "} " + Judged.main("", first + first + "return;"));
+            for (int m = 17; m < 107; m++) {
+                Judged.due("once", x.reached(m, 1), 1);
+                Judged.due("not once", y.reached(m, 1), 0);
+            }
+        }
+    }
+
+    /** "ways as the check goes, 'catch' too": of the last of a hundred 'catch'es as of the first */
+    private static void behindManyCatches() {
+        String more = times("static method void c#() { A: push 1; pop; B: return; H: pop; return; " + times("catch Cast A B H; ", 8) + "} ", 12);
+        String last = "static method void l(Object) { A: load 0; store 1; new Object; store 0; C: push 1; push 0; div; pop; D: return; H: pop; load 0; pop; goto A; catch Arithmetic C D H; } ";
+        for (String classes : new String[] {last + more, more + last}) {
+            ThreadJudge x = of(0, Judged.main("class A { " + classes + "} ", "string \"a\"; call void A.l(Object); return;"));
+            int m = classes.startsWith(last) ? 17 : 29;
+            int from = x.method(m, 3);
+            Judged.due("'catch'es", x.method(m, 6), 1);
+            Judged.due("the string, and by way of the 'catch' the Object", x.holds(from, 0, -1), 2);
+            Judged.due("into the handler", x.holds(from + 9, 0, -1), 1);
+            Judged.due("Arithmetic", x.object(x.holds(from + 9, 10, 0), 0), 5007);
+            Judged.due("the new Object is not singular", x.object(x.holds(from + 9, 0, 0), 3), 0);
+            Judged.due("called by one that is once", x.reached(m, 1), 1);
+            Judged.due("height in the handler", x.instruction(from + 9, 3), 1);
+            Judged.due("kind in the handler", x.kind(from + 9, 10, 7), 1);
+            Judged.due("local in the handler", x.kind(from + 9, 0, 0), 1);
+        }
     }
 
     /** A call on 70 objects of two classes. */

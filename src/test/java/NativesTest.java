@@ -17,6 +17,7 @@ public final class NativesTest {
         foundInItsClassAlone();
         lambdaOfMany();
         hooksByContexts();
+        eachOfSeveral();
         Judged.end();
     }
 
@@ -54,6 +55,62 @@ public final class NativesTest {
             all.append(x.calls(i, false, k)).append(' ');
         }
         return all.toString();
+    }
+
+    /** Of several arrays, things with fields, strings and receivers, each in a local of its own, an instruction takes what it takes, not the first one, nor those behind. */
+    private static void eachOfSeveral() {
+        String classes = "class K { field Object o; method void a() { return; } method void b() { return; } method void c() { return; } } class L extends K { } class M extends K { } ";
+        for (int k = 1; k < 4; k++) {
+            // arrays: the first of all objects, the second, the third
+            String makes = "push 1; array Object; store 1; push 1; array Object; store 2; push 1; array Object; store 3; ";
+            String puts = "load 1; push 0; string \"x\"; setelement; load 2; push 0; string \"y\"; setelement; load 3; push 0; string \"z\"; setelement; ";
+            ThreadJudge x = of(Judged.main(classes, makes + puts + "load " + k + "; push 0; element; return;"));
+            int last = x.count(6) - 1;
+            same("element of array " + k, at(x, last, 10), (1999 + k) + " ");
+            for (int o = 0; o < 3; o++) {
+                Judged.due("elements of " + o, x.field(o, -1, -1), 1);
+                Judged.due("its string", x.object(x.field(o, -1, 0), 0), 2000 + o);
+            }
+            // one of the three takes what comes, the others do not
+            x = of(Judged.main(classes, makes + "load " + k + "; push 0; string \"x\"; setelement; load 1; push 0; element; pop; load 2; push 0; element; pop; load 3; push 0; element; return;"));
+            last = x.count(6) - 1;
+            for (int o = 0; o < 3; o++) {
+                Judged.due("elements", x.field(o, -1, -1), o == k - 1 ? 1 : 0);
+                same("element", at(x, last - 8 + 4 * o, 10), o == k - 1 ? "2000 " : "");
+            }
+            // fields
+            String things = "new K; store 1; new K; store 2; new K; store 3; ";
+            x = of(Judged.main(classes, things + "load " + k + "; string \"x\"; put K.o; load 1; get K.o; pop; load 2; get K.o; pop; load 3; get K.o; return;"));
+            last = x.count(6) - 1;
+            for (int o = 0; o < 3; o++) {
+                Judged.due("field", x.field(o, 1, -1), o == k - 1 ? 1 : 0);
+                same("got", at(x, last - 6 + 3 * o, 10), o == k - 1 ? "2000 " : "");
+            }
+            // strings of find; receivers of invoke; of 49, 50
+            String names = "string \"a\"; store 1; string \"b\"; store 2; string \"c\"; store 3; ";
+            x = of(Judged.main(classes, names + "string \"K\"; call Class Class.named(String); load " + k + "; virtual Method Class.find(String); return;"));
+            same("found by string " + k, at(x, x.count(6) - 1, 10), (4000 + 17 + k - 1) + " ");
+            for (String call : new String[] {found("K", "a") + "load @; virtual Object Method.invoke(Object); pop;", "load @; virtual void K.a();", "load @; cast K; virtual void K.a();"}) {
+                x = of(Judged.main(classes, "new K; store 1; new L; store 2; new M; store 3; " + call.replace("@", "" + k) + " return;"));
+                same("receiver " + k + " of " + call, at(x, 14, 0), (17 + 2 * k - 2) + " ");
+            }
+            x = of(Judged.main(classes + "class T extends Thread { method void run() { return; } } ", "new T; store 1; new T; store 2; new T; store 3; load " + k + "; virtual void Thread.start(); load " + (k % 3 + 1) + "; call void Runtime.hook(Thread); return;"));
+            Judged.due("threads", x.count(10), 3);
+            for (int o = 0; o < 3; o++) {
+                Judged.due("started " + o, x.object(o, 5) > 0 ? 1 : 0, o == k - 1 || o == k % 3 ? 1 : 0);
+                Judged.due("escapes " + o, x.object(o, 4), o == k - 1 || o == k % 3 ? 1 : 0);
+            }
+            String[] named = {"K", "L", "M"};
+            String classNames = "string \"K\"; store 1; string \"L\"; store 2; string \"M\"; store 3; ";
+            x = of(Judged.main(classes, classNames + "load " + k + "; call Class Class.named(String); virtual Object Class.newInstance(); return;"));
+            same("made of " + named[k - 1], at(x, x.count(6) - 1, 10), (6000 + 18 + k) + " ");
+            Judged.due("begins", x.begins(19) * 100 + x.begins(20) * 10 + x.begins(21), 100 + (k == 2 ? 10 : 0) + (k == 3 ? 1 : 0));
+        }
+        // what holds others, and does not escape itself
+        ThreadJudge x = of(Judged.main(classes, "new K; store 1; new K; store 2; load 1; load 2; put K.o; push 1; array Object; store 3; load 3; push 0; load 1; setelement; load 3; push 0; load 2; setelement; lambda Runnable void Main.main(); pop; return;"));
+        for (int o = 0; o < x.count(9); o++) {
+            Judged.due("none escapes: " + o, x.object(o, 4), 0);
+        }
     }
 
     /** What the machine throws at the last of these lines (- 1: nothing), and what that leaves by what may be. */
