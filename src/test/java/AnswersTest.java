@@ -28,6 +28,7 @@ public final class AnswersTest {
         lastAnswerStays();
         nothingAnalysed();
         answered();
+        racingOfSeveral();
         longQuestions();
         Judged.end();
     }
@@ -45,6 +46,35 @@ public final class AnswersTest {
         String question = place < 0 ? marked : marked.substring(0, place) + marked.substring(place + 1);
         Judged.due(marked, Judged.ask(x, question), -1 - (place < 0 ? question.length() : place));
         x = fresh(x);
+    }
+
+    /** "racing (an instruction of a RACE stands in it)": each method of several that race with one instruction, and with several */
+    private static void racingOfSeveral() {
+        for (int writes = 1; writes < 16; writes++) {
+            StringBuilder all = new StringBuilder();
+            StringBuilder calls = new StringBuilder();
+            for (int k = 0; k < 4; k++) {
+                all.append("class C").append(k).append(" { static method void m() { ").append((writes >> k & 1) != 0 ? "push 1; putstatic Main.n; return; } } " : "getstatic Main.n; pop; return; } } ");
+                calls.append("call void C").append(k).append(".m(); ");
+            }
+            // C0's m is run's alone; main calls the others
+            ThreadJudge y = Judged.loaded(all + "class T extends Thread { method void run() { call void C0.m(); return; } } class Main { static field int n; static method void main() { new T; virtual void Thread.start(); "
+                + calls.substring("call void C0.m(); ".length()) + "return; } }");
+            y.analyse(0, 300);
+            StringBuilder due = new StringBuilder();
+            for (int k = 1; k < 4; k++) {
+                due.append((writes & 1) != 0 || (writes >> k & 1) != 0 ? " " + (17 + k) : "");
+            }
+            if (due.length() > 0) {
+                due.insert(0, " 17");
+            }
+            int n = Judged.ask(y, "racing");
+            StringBuilder got = new StringBuilder();
+            for (int k = 0; k < n; k++) {
+                got.append(" ").append(y.answered(k));
+            }
+            Judged.yes("racing of " + writes + ":" + got + ", due is" + due, got.toString().equals(due.toString()));
+        }
     }
 
     private static int asked;

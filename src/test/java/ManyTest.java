@@ -20,6 +20,10 @@ public final class ManyTest {
         heldByManyInstances();
         onceByMany();
         behindManyCatches();
+        lateObjects();
+        lateThreads();
+        parallelInOneOfMany();
+        heldByLongRows();
         Judged.end();
     }
 
@@ -172,6 +176,109 @@ public final class ManyTest {
             Judged.due("height in the handler", x.instruction(from + 9, 3), 1);
             Judged.due("kind in the handler", x.kind(from + 9, 10, 7), 1);
             Judged.due("local in the handler", x.kind(from + 9, 0, 0), 1);
+        }
+    }
+
+    /** Seven contexts of 58 sites, and their receivers: 413 objects that come to be ahead of those of class Z. */
+    private static String behindMany(String z, String more) {
+        return "class A { method void m() { " + times("new Object; pop; ", 58) + "return; } } " + more + "class Z { " + z + "} " + Judged.main("", times("new A; virtual void A.m(); ", 7) + "call void Z.z(); return;");
+    }
+
+    /** Monitors, knots, calls of wait(), accesses of objects that come to be behind 400 others. */
+    private static void lateObjects() {
+        String t = "class T extends Thread { field int n; synchronized method void run() { load 0; get T.n; pop; return; } synchronized method void s() { return; } } ";
+        String z = "static field T t; static method void z() { new T; dup; putstatic Z.t; store 1; load 1; virtual void Thread.start(); load 1; push 1; put T.n; load 1; virtual void T.s(); "
+            + "string \"y\"; enter; string \"z\"; enter; call void Z.in(); null; exit; null; exit; string \"z\"; enter; string \"y\"; enter; null; exit; null; exit; "
+            + "string \"w\"; enter; L: string \"w\"; virtual void Object.wait(); push 1; ifeq L; null; exit; return; } static method void in() { string \"v\"; enter; null; exit; return; } ";
+        ThreadJudge x = of(2, behindMany(z, t));
+        Judged.due("objects", x.count(9), 406 + 7 + 1 + 4 + 3);
+        int run = x.method(18, 3);
+        int s = x.method(19, 3);
+        int first = x.method(20, 3);
+        int in = x.method(21, 3);
+        Judged.due("instances", x.count(8), 1 + 7 + 1 + 1 + 1 + 1 + 1);
+        Judged.due("threads", x.count(10), 2);
+        Judged.due("single", x.thread(1, 1), 1);
+        Judged.due("its object escapes", x.object(x.thread(1, 0), 4), 1);
+        // fields of T: n 1, Z's t 2
+        Judged.due("a race of get and put", x.count(12), 1);
+        Judged.due("get", x.race(0, 0), run + 1);
+        Judged.due("put", x.race(0, 1), first + 8);
+        Judged.due("run's LOCK", x.held(run + 1, true, -1), 1);
+        Judged.due("is the thread's object", x.held(run + 1, true, 0), x.thread(1, 0));
+        Judged.due("s's LOCK", x.held(s, true, -1) * 10 + x.held(s, false, -1), 11);
+        Judged.due("held in what is called", x.held(in, true, -1) * 10 + x.held(in, false, -1), 22);
+        Judged.due("and within", x.held(in + 2, true, -1) * 10 + x.held(in + 2, false, -1), 33);
+        // y z, z y; v is wanted while y and z are held, but leads to none
+        Judged.due("knots", x.count(13), 2);
+        int y = x.held(in, true, 0);
+        int zz = x.held(in, true, 1);
+        Judged.due("y", x.object(y, 0), 2000);
+        Judged.due("z", x.object(zz, 0), 2001);
+        Judged.due("y is held", x.knot(0, 1) * 1000 + x.knot(0, 2), y * 1000 + zz);
+        Judged.due("z is held", x.knot(1, 1) * 1000 + x.knot(1, 2), zz * 1000 + y);
+        Judged.due("neither loose nor rash", x.count(14), 0);
+        // what both hold makes no race
+        x = of(2, behindMany(z.replace("load 1; push 1; put T.n;", "load 1; push 1; call void Z.p(T, int);") + "static method void p(T, int) { load 0; enter; load 0; load 1; put T.n; null; exit; return; } ", t));
+        Judged.due("no race", x.count(12), 0);
+    }
+
+    /** "BEFORE", "PARALLEL": the last of 464 threads meets MAIN as the first one does. */
+    private static void lateThreads() {
+        for (int late = 0; late < 2; late++) {
+            String u = "class T extends Thread { method void run() { return; } } class U extends T { method void run() { return; } } ";
+            String starts = times("new T; virtual void Thread.start(); ", 57);
+            String one = "new U; virtual void Thread.start(); ";
+            ThreadJudge x = of(2, u + "class A { method void m() { " + (late == 0 ? one + starts : starts + one) + "return; } } " + Judged.main("", times("new A; virtual void A.m(); ", 8) + "return;"));
+            Judged.due("threads", x.count(10), 465);
+            int run = x.method(18, 3);
+            int main = x.method(20, 3);
+            for (int i = 0; i < 17; i += 8) {
+                Judged.due("U's run with main's " + i, x.parallel(run, main + i), 1);
+                Judged.due("the other way round", x.parallel(main + i, run), 1);
+            }
+            Judged.due("of several threads", x.parallel(run, run), 1);
+            Judged.due("T's with U's", x.parallel(x.method(17, 3), run), 1);
+            int last = late == 0 ? 8 : 464;
+            Judged.due("the object of a thread", x.object(x.thread(last, 0), 2), 20);
+            Judged.due("is that thread", x.object(x.thread(last, 0), 5), last);
+            Judged.due("runs run and uncaught", x.thread(last, 2), 2);
+        }
+    }
+
+    /** "Two instructions in instances may be PARALLEL": in the first of thirty instances as in the last. */
+    private static void parallelInOneOfMany() {
+        String k = "class K { static method void k() { return; } static method void r() { return; } } class T extends Thread { method void run() { call void K.r(); return; } } ";
+        String start = "new T; virtual void Thread.start(); ";
+        String calls = times("call void K.k(); ", 30);
+        String[] mains = {"goto B; A: call void K.k(); return; B: " + calls + start + "goto A;", calls + start + "call void K.k(); return;", "goto B; A: return; B: " + calls + start + "goto A;"};
+        for (int n = 0; n < mains.length; n++) {
+            ThreadJudge x = of(1, Judged.main(k, mains[n]));
+            Judged.due("instances", x.reached(17, 0), n == 2 ? 30 : 31);
+            Judged.due("k with r", x.parallel(14, 15), n == 2 ? 0 : 1);
+            Judged.due("r with k", x.parallel(15, 14), n == 2 ? 0 : 1);
+        }
+    }
+
+    /** "MAY BE HELD .. at any instruction that calls it", "of all sets for which this holds the greatest": by rows of calls that go against the order of instances. */
+    private static void heldByLongRows() {
+        StringBuilder all = new StringBuilder();
+        StringBuilder calls = new StringBuilder();
+        for (int k = 0; k < 40; k++) {
+            all.append("static method void m").append(k).append("() { ").append(k < 39 ? "call void K.m" + (k + 1) + "(); " : "").append("return; } ");
+            calls.insert(0, "call void K.m" + k + "(); ");
+        }
+        String k = "class K { " + all + "} ";
+        // all are called without; then the first with a monitor
+        ThreadJudge x = of(0, Judged.main(k, calls + "string \"a\"; enter; call void K.m0(); null; exit; return;"));
+        ThreadJudge y = of(0, Judged.main(k, "string \"a\"; enter; " + calls + "null; exit; return;"));
+        ThreadJudge z = of(0, Judged.main(k, "string \"a\"; enter; " + calls + "null; exit; call void K.m0(); return;"));
+        for (int m = 17; m < 57; m++) {
+            int i = x.method(m, 3);
+            Judged.due("may be held", x.held(i, false, -1), 1);
+            Judged.due("not surely", x.held(i, true, -1), 0);
+            Judged.due("surely", y.held(i, true, -1), 1);
+            Judged.due("once without", z.held(i, true, -1), 0);
         }
     }
 

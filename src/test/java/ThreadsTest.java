@@ -411,6 +411,20 @@ public final class ThreadsTest {
         meets(start + "push 1; ifeq L; load 1; goto M; L: null; M: virtual void Thread.join(); return;", "0000" + "1111110");
         ThreadJudge x = of(Judged.main("class T extends Thread { method void run() { return; } method void join() { return; } } ", start + "load 1; virtual void Thread.join(); return;"));
         meets(x, x.method(19, 3), "a join of its own", "0000111");
+        // the 'catch'es of other methods, ahead of MAIN and behind it, are none of its own
+        String caught = "static method void c() { A: push 1; pop; B: return; H: pop; return; catch Throwable A B H; catch Cast A B H; } ";
+        for (int first = 0; first < 2; first++) {
+            for (int within = 0; within < 2; within++) {
+                String lines = start + "A: load 1; virtual void Thread.join(); " + (within == 1 ? "B: push 1; " : "push 1; ") + "pop; " + (within == 1 ? "" : "B: ") + "return; H: pop; return; catch Throwable A B H;";
+                String other = "class C { " + caught + "} class D { " + caught + "} ";
+                String plain = within == 1 ? lines : lines.replace("A: load 1; virtual void Thread.join(); ", "load 1; virtual void Thread.join(); A: ");
+                String classes = "class T extends Thread { method void run() { return; } } ";
+                x = of(first == 1 ? Judged.main(classes + other, plain) : Judged.main(classes, plain) + " " + other);
+                int run = x.method(17, 3);
+                int pop = x.method(first == 1 ? 20 : 18, 3) + 7;
+                Judged.due("behind a join " + (within == 1 ? "within" : "ahead of") + " a 'catch'", x.parallel(run, pop), within);
+            }
+        }
         // the join itself is not behind by itself, but by another one
         meets(start + "L: load 1; virtual void Thread.join(); push 1; ifeq L; return;", "0000" + "11000");
     }
