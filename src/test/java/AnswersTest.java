@@ -29,6 +29,7 @@ public final class AnswersTest {
         nothingAnalysed();
         answered();
         racingOfSeveral();
+        partsInBrackets();
         longQuestions();
         Judged.end();
     }
@@ -74,6 +75,27 @@ public final class AnswersTest {
                 got.append(" ").append(y.answered(k));
             }
             Judged.yes("racing of " + writes + ":" + got + ", due is" + due, got.toString().equals(due.toString()));
+        }
+    }
+
+    /** "a PART TERMS with & between", in brackets as without, whatever stands ahead of them */
+    private static void partsInBrackets() {
+        int[][] sets = {{17, 18, 19, 20}, {21, 22}, {24}, {}};
+        String[] names = {"A", "B", "main", "B.x"};
+        String[] ahead = {"", "B.x | ", "native - native | ", "T & B | ", "A.x - "};
+        for (int p = 0; p < 4; p++) {
+            for (int q = 0; q < 4; q++) {
+                int[] both = p == q ? sets[p] : new int[0];
+                for (String first : ahead) {
+                    // on a new object nothing stands from a question before
+                    anew();
+                    is("(" + names[p] + " & " + names[q] + ")", both);
+                    anew();
+                    is(first + "((" + names[p] + " & all & " + names[q] + "))", first.endsWith("- ") ? new int[0] : both);
+                    is("all & (" + names[p] + " & (" + names[q] + " & all))", both);
+                    is("callers(A.s) & (A & (A.a & A))", 17);
+                }
+            }
         }
     }
 

@@ -8,6 +8,7 @@ public final class LimitsTest {
         hooks();
         lastInstructions();
         lastStringsClassesMethods();
+        clashesFarApart();
         things();
         threads();
         Judged.end();
@@ -202,7 +203,7 @@ public final class LimitsTest {
         }
         String all = strings + "string \"Object\"; call Class Class.named(String); pop; string \"Z\"; call Class Class.named(String); dup; string \"m98\"; virtual Method Class.find(String); dup; null; virtual Object Method.invoke(Object); pop; pop; string \"m98\"; virtual Method Class.find(String); pop; ";
         String text = "class Main { static method void main() { push 0; store 1; L: " + all + "inc 1 1; load 1; push 2; cmplt L; return; } } " + times("class C# { } ", 22)
-            + "class Z { " + times("static method void m#() { push #; call void Out.print(int); return; } ", 99) + "}";
+            + "class Z { " + times("static method void m#() {return;} ", 98) + "static method void m98() { push 98; call void Out.print(int); return; } }";
         ThreadJudge x = Judged.loaded(text);
         Judged.due("strings", x.count(7), 32);
         Judged.due("classes", x.count(3), 43);
@@ -226,6 +227,36 @@ public final class LimitsTest {
         Judged.due("said", x.count(20), 2);
         Judged.due("by the last METHOD", x.said(0) * 100 + x.said(1), 9898);
         Judged.yes("foreseen", x.foreseen());
+    }
+
+    /** "each pair of instructions once": pairs of instructions that stand far apart are pairs of their own. */
+    private static void clashesFarApart() {
+        String rw = "getstatic Main.n; putstatic Main.n; ";
+        for (int apart = 60; apart < 900; apart += 20) {
+            StringBuilder fill = new StringBuilder();
+            for (int rest = apart - 3; rest > 0; rest -= 119) {
+                int n = Math.min(rest, 119) - 1;
+                fill.append("static method void f").append(rest).append("() {").append(times("null;pop;", n / 2)).append(n % 2 == 1 ? "goto L;L:" : "").append("return;} ");
+            }
+            String text = "class T extends Thread { method void run() { " + rw + "return; } } class M { static method void one() { " + rw + "return; } " + fill + "static method void two() { " + rw + "return; } } "
+                + "class Main { static field int n; static method void main() { new T; virtual void Thread.start(); call void M.one(); call void M.two(); return; } }";
+            ThreadJudge x = Judged.loaded(text);
+            Judged.due("apart", x.method(x.count(5) - 2, 3) - x.method(18, 3), apart);
+            x.analyse(0, 300);
+            x.begin();
+            for (int t : new int[] {0, 0, 1, 1, 1}) {
+                x.step(t);
+            }
+            x.run(100, 1);
+            Judged.due("clashes of those " + apart + " apart", x.count(21), 6);
+            int[][] due = {{15, 17}, {14, 18}, {15, 18}, {15, 17 + apart}, {14, 18 + apart}, {15, 18 + apart}};
+            for (int k = 0; k < 6; k++) {
+                Judged.due("lesser", x.clash(k, 0), due[k][0]);
+                Judged.due("greater", x.clash(k, 1), due[k][1]);
+            }
+            Judged.due("races", x.count(12), 6);
+            Judged.yes("foreseen", x.foreseen());
+        }
     }
 
     private static void things() {

@@ -156,6 +156,17 @@ public final class ManyTest {
                 Judged.due("once", x.reached(m, 1), 1);
                 Judged.due("not once", y.reached(m, 1), 0);
             }
+            x = of(0, "class A { " + all + "} " + Judged.main("", first + "return;"));
+            int start = way == 0 ? 17 : 106;
+            int end = way == 0 ? 106 : 17;
+            Judged.due("from the first", Judged.ask(x, "from(A.m" + (start - 17) + ")"), 90);
+            Judged.due("into the last", Judged.ask(x, "into(A.m" + (end - 17) + ")"), 91);
+            Judged.due("callers alone", Judged.ask(x, "callers(A.m" + (end - 17) + ")"), 1);
+            Judged.due("callees alone", Judged.ask(x, "callees(A.m" + (start - 17) + ")"), 1);
+            Judged.due("the way to the last", x.way(end, -1), 90);
+            for (int k = 0; k < 90; k++) {
+                Judged.due("its instructions", x.instruction(x.way(end, k), 1), k == 0 ? 107 : way == 0 ? 16 + k : 107 - k);
+            }
         }
     }
 
