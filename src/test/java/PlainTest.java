@@ -47,6 +47,9 @@ public final class PlainTest {
             loaded += new PlainTest(text, r).hold() ? 1 : 0;
         }
         Judged.yes("enough programs load", loaded * 3 > to - from);
+        for (int seed = from * 40; seed < to * 40; seed++) {
+            new PlainTest(new SoupMaker(seed).text(), new Random(seed)).holdProgram();
+        }
         Judged.end();
     }
 
@@ -71,16 +74,22 @@ public final class PlainTest {
     }
 
     /** True if the text loads. */
-    private boolean hold() {
+    private boolean holdProgram() {
         due("load()", x.load(), p.fault);
         due("the fault", x.count(0), p.fault);
         due("its place", x.count(1), p.place);
-        if (p.fault != 0) {
+        if (p.fault == 0) {
+            holdCounts();
+            holdClasses();
+            holdCode();
+        }
+        return p.fault == 0;
+    }
+
+    private boolean hold() {
+        if (!holdProgram()) {
             return false;
         }
-        holdCounts();
-        holdClasses();
-        holdCode();
         for (int policy = 0; policy < 4; policy++) {
             int granted = r.nextInt(3) == 0 ? 1 + r.nextInt(60) : 300;
             j = new PlainJudge(p, policy, granted);
